@@ -23,30 +23,19 @@ public final class FencedRows {
     private static final int GROUP = 100000;
     private static final int MOST_TURNS = 60;
 
-    private final Meadow now;
-    private final Meadow fresh;
-    private final Meadow trial;
-    private final Search search;
-    private final Herder herder;
-    private final Herder trialHerder;
-    private final Planner planner;
-    private final SubsetSums subsetSums;
-    private final History history;
-    private final Slots slots;
-    private final Text text;
+    private final Herder herder = new Herder();
+    private final Meadow now = herder.meadow;
+    private final Herder trialHerder = new Herder();
+    private final Meadow trial = trialHerder.meadow;
+    private final Meadow fresh = new Meadow();
+    private final Search search = new Search();
+    private final Planner planner = new Planner();
+    private final SubsetSums subsetSums = new SubsetSums();
+    private final History history = new History();
+    private final Slots slots = new Slots();
+    private final Text text = new Text();
 
     public FencedRows() {
-        now = new Meadow();
-        fresh = new Meadow();
-        trial = new Meadow();
-        search = new Search();
-        herder = new Herder(now, search);
-        trialHerder = new Herder(trial, search);
-        planner = new Planner();
-        subsetSums = new SubsetSums();
-        history = new History();
-        slots = new Slots();
-        text = new Text();
     }
 
     // ---- text
@@ -241,7 +230,7 @@ public final class FencedRows {
         }
         history.remember(now);
         herder.doSeek(way);
-        return search.looked;
+        return herder.search.looked;
     }
 
     public int trust(int v) throws IllegalArgumentException {
@@ -958,13 +947,8 @@ public final class FencedRows {
 
     /** Does to a meadow what texts, scripts and simulations ask for, and answers whether it could be done. */
     private static final class Herder {
-        private final Meadow meadow;
-        private final Search search;
-
-        Herder(Meadow meadow, Search search) {
-            this.meadow = meadow;
-            this.search = search;
-        }
+        private final Meadow meadow = new Meadow();
+        private final Search search = new Search();
 
         boolean obey(int letter, int first, int second) {
             switch (letter) {
