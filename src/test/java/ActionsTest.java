@@ -194,6 +194,8 @@ public final class ActionsTest {
         x.lie(1, -2);
         CHECKS.is("14: below 0", x.tell(), -2 + 46 + 19 - 1 - 2);
         CHECKS.is("14: a block below 0", x.blockOf(0, 5), -2);
+        x.fence(2, false);
+        CHECKS.is("14: fewer blocks than were told before", x.tell(), 46 + 19 - 1);
         FencedRows none = new FencedRows();
         for (int r = 0; r < 48; r++) {
             none.away(r, true);

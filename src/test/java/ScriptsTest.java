@@ -145,6 +145,7 @@ public final class ScriptsTest {
         FencedRows x = meadow();
         for (int n : new int[] {0, 4, -1, Integer.MIN_VALUE, Integer.MAX_VALUE}) {
             CHECKS.throwsArgument("25: n " + n, x, () -> x.runScript(n, 40000L));
+            CHECKS.throwsArgument("25: n " + n + ", script 0", x, () -> x.runScript(n, 0L));
         }
         long[] tooLong = {100000L, 10000000000L, 1000000000000000L};
         for (int n = 1; n <= 3; n++) {

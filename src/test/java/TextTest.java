@@ -133,10 +133,14 @@ public final class TextTest {
         CHECKS.is("5: n", x.about(4), 1);
         CHECKS.is("5: the sum of a lie", x.blockOf(0, 5), 98 + 10 - 1 - 2);
         CHECKS.is("5: lies of digits 1, 3 and 4", lies(Checks.loaded("Mf10f20l001l013l024")), -1 + 10 + 200);
-        FencedRows s = Checks.loaded("Ms03");
+        FencedRows s = new FencedRows();
+        Checks.type(s, "Ms03");
+        CHECKS.is("5: s is not left out", s.load(), 0);
         CHECKS.is("5: s", s.about(0), 4);
         CHECKS.is("5: s spreads evenly", s.blockOf(1, 0), 12);
-        FencedRows k = Checks.loaded("Ma01nk0");
+        FencedRows k = new FencedRows();
+        Checks.type(k, "Ma01nk0");
+        CHECKS.is("5: a, n and k are not left out", k.load(), 0);
         CHECKS.is("5: k is an action", k.about(6), 1);
         CHECKS.is("5: k adds losses", k.rowOf(1, 2), 1);
         CHECKS.is("5: k counts looks", k.about(5) > 0 ? 1 : 0, 1);

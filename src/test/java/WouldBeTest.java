@@ -16,6 +16,8 @@ public final class WouldBeTest {
         promise22Balanced();
         promise22Throws();
         promise23CanBe();
+        promise23Sixty4();
+        promise23BelowZero();
         promise23Throws();
         promise24Farthest();
         CHECKS.end();
@@ -222,6 +224,12 @@ public final class WouldBeTest {
         x.away(20, true);
         x.fence(3, true);
         CHECKS.is("22: who is away and where fences are does not matter", x.balanced(2), 99);
+        FencedRows front = new FencedRows();
+        front.weigh(0, 99);
+        CHECKS.is("22: the first row is heavy", front.balanced(1), 99);
+        FencedRows back = new FencedRows();
+        back.weigh(47, 99);
+        CHECKS.is("22: the last row is heavy", back.balanced(1), 99);
         for (int r = 0; r < 48; r++) {
             x.weigh(r, 99);
         }
@@ -284,6 +292,34 @@ public final class WouldBeTest {
         heavy.lie(0, 0);
         heavy.tell();
         CHECKS.is("23: all but one", heavy.canBe(0), 1);
+    }
+
+    private static void promise23Sixty4() {
+        FencedRows x = four(64, 64, 1, 1);
+        x.away(2, true);
+        x.away(3, true);
+        x.tell();
+        CHECKS.is("23: 64 and 64", x.canBe(0), 1);
+        x.weigh(1, 99);
+        CHECKS.is("23: 128 of 64, 99, 1 and 1", x.canBe(0), 0);
+        x.away(1, true);
+        x.tell();
+        CHECKS.is("23: 64 of 64, 99, 1 and 1", x.canBe(0), 1);
+    }
+
+    private static void promise23BelowZero() {
+        for (int weight = 1; weight <= 3; weight++) {
+            FencedRows x = new FencedRows();
+            for (int r = 0; r < 48; r++) {
+                x.weigh(r, weight);
+                x.away(r, true);
+            }
+            for (int lie = -2; lie <= 0; lie++) {
+                x.lie(0, lie);
+                x.tell();
+                CHECKS.is("23: " + lie + " of 48 rows of " + weight, x.canBe(0), lie < 0 ? 0 : 1);
+            }
+        }
     }
 
     private static void promise23Throws() {
