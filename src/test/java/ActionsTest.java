@@ -204,17 +204,6 @@ public final class ActionsTest {
         CHECKS.is("14: all together below 0", none.tell(), -2);
     }
 
-    /** Rows 0 to 3 in a block of their own, of these weights. */
-    private static FencedRows four(int a, int b, int c, int d) {
-        FencedRows x = new FencedRows();
-        x.fence(4, true);
-        x.weigh(0, a);
-        x.weigh(1, b);
-        x.weigh(2, c);
-        x.weigh(3, d);
-        return x;
-    }
-
     /** The rows 0 to 3 that were taken, as a number of bits; -1 if others were, too. */
     private static int taken(FencedRows x) {
         int bits = 0;
@@ -230,33 +219,33 @@ public final class ActionsTest {
     }
 
     private static void promise15Halves() {
-        FencedRows none = four(1, 1, 1, 1);
+        FencedRows none = Checks.four(1, 1, 1, 1);
         none.tell();
         seeks("nobody away", none, 0, 0, 0);
         int[] alone = {2, 2, 2, 2};
         for (int r = 0; r < 4; r++) {
-            FencedRows x = four(1, 1, 1, 1);
+            FencedRows x = Checks.four(1, 1, 1, 1);
             x.away(r, true);
             x.tell();
             seeks("row " + r, x, 0, alone[r], 1 << r);
         }
-        FencedRows left = four(1, 1, 1, 1);
+        FencedRows left = Checks.four(1, 1, 1, 1);
         left.away(0, true);
         left.away(1, true);
         left.tell();
         seeks("a whole half", left, 0, 1, 3);
-        FencedRows all = four(1, 1, 1, 1);
+        FencedRows all = Checks.four(1, 1, 1, 1);
         for (int r = 0; r < 4; r++) {
             all.away(r, true);
         }
         all.tell();
         seeks("a whole block", all, 0, 0, 15);
-        FencedRows two = four(1, 1, 1, 1);
+        FencedRows two = Checks.four(1, 1, 1, 1);
         two.away(1, true);
         two.away(2, true);
         two.tell();
         seeks("one in each half", two, 0, 3, 6);
-        FencedRows blocks = four(1, 1, 1, 1);
+        FencedRows blocks = Checks.four(1, 1, 1, 1);
         blocks.fence(6, true);
         blocks.away(0, true);
         blocks.away(5, true);
@@ -267,62 +256,62 @@ public final class ActionsTest {
     }
 
     private static void promise15Lies() {
-        FencedRows less = four(1, 1, 1, 1);
+        FencedRows less = Checks.four(1, 1, 1, 1);
         less.lie(0, -1);
         less.tell();
         seeks("nobody, a lie of -1", less, 0, 2, 8);
         CHECKS.is("15: wrongly", less.about(7), 1);
         CHECKS.is("15: missed", less.about(8), 0);
-        FencedRows more = four(1, 1, 1, 1);
+        FencedRows more = Checks.four(1, 1, 1, 1);
         more.lie(0, 1);
         more.away(1, true);
         more.tell();
         seeks("a lie that hides it", more, 0, 0, 0);
         CHECKS.is("15: it was missed", more.about(8), 1);
-        FencedRows heavy = four(1, 1, 1, 2);
+        FencedRows heavy = Checks.four(1, 1, 1, 2);
         heavy.lie(0, -1);
         heavy.tell();
         seeks("a look at one row that is there", heavy, 0, 3, 0);
-        FencedRows below = four(1, 1, 1, 1);
+        FencedRows below = Checks.four(1, 1, 1, 1);
         below.lie(0, -2);
         for (int r = 0; r < 4; r++) {
             below.away(r, true);
         }
         below.tell();
         seeks("more lacking than the book", below, 0, 3, 15);
-        FencedRows above = four(1, 1, 1, 1);
+        FencedRows above = Checks.four(1, 1, 1, 1);
         above.lie(0, 2);
         above.tell();
         seeks("a sum above the book", above, 0, 0, 0);
     }
 
     private static void promise15OutOfDate() {
-        FencedRows late = four(1, 1, 1, 1);
+        FencedRows late = Checks.four(1, 1, 1, 1);
         late.tell();
         late.away(2, true);
         seeks("away since the telling", late, 0, 0, 0);
         CHECKS.is("15: missed since then", late.about(8), 1);
-        FencedRows look = four(1, 1, 1, 2);
+        FencedRows look = Checks.four(1, 1, 1, 2);
         look.lie(0, -1);
         look.tell();
         look.away(3, true);
         seeks("a look at one row that is away", look, 0, 3, 8);
         CHECKS.is("15: not wrongly", look.about(7), 0);
-        FencedRows moved = four(1, 1, 1, 1);
+        FencedRows moved = Checks.four(1, 1, 1, 1);
         moved.away(3, true);
         moved.tell();
         moved.away(0, true);
         moved.away(1, true);
         seeks("the left has more than is lacking", moved, 0, 1, 3);
         CHECKS.is("15: the right is not searched", moved.about(8), 1);
-        FencedRows weighs = four(1, 1, 1, 1);
+        FencedRows weighs = Checks.four(1, 1, 1, 1);
         weighs.tell();
         weighs.weigh(2, 3);
         seeks("heavier since the telling", weighs, 0, 3, 0);
     }
 
     private static void promise15Ways() {
-        FencedRows x = four(1, 1, 1, 9);
+        FencedRows x = Checks.four(1, 1, 1, 9);
         x.away(3, true);
         x.tell();
         CHECKS.is("15: by rows", x.ifSought(0, 0), 2);
@@ -344,7 +333,7 @@ public final class ActionsTest {
     }
 
     private static void promise15Untrusted() {
-        FencedRows x = four(1, 1, 1, 1);
+        FencedRows x = Checks.four(1, 1, 1, 1);
         x.trust(0);
         seeks("a look at each block", x, 0, 2, 0);
         x.away(1, true);
@@ -369,7 +358,7 @@ public final class ActionsTest {
             CHECKS.is("15: losses of row 47", x.rowOf(47, 2), Math.min(99, i));
         }
         CHECKS.is("15: others have none", x.about(10), 2 * 99);
-        FencedRows first = four(1, 1, 1, 1);
+        FencedRows first = Checks.four(1, 1, 1, 1);
         first.away(3, true);
         first.tell();
         first.seek(2);
@@ -377,7 +366,7 @@ public final class ActionsTest {
     }
 
     private static void promise15Throws() {
-        FencedRows x = four(1, 1, 1, 1);
+        FencedRows x = Checks.four(1, 1, 1, 1);
         for (int way : new int[] {-1, 3, Integer.MIN_VALUE, Integer.MAX_VALUE}) {
             CHECKS.throwsArgument("15: way " + way + ", and no sums", x, () -> x.seek(way));
         }
@@ -432,7 +421,7 @@ public final class ActionsTest {
     }
 
     private static void undone(String what, Action action) {
-        FencedRows x = four(3, 5, 7, 9);
+        FencedRows x = Checks.four(3, 5, 7, 9);
         x.away(1, true);
         x.away(40, true);
         x.lie(0, 1);
@@ -464,7 +453,7 @@ public final class ActionsTest {
 
     /** Calls that throw, questions and slots are not remembered. */
     private static void promise17Forgets() {
-        FencedRows x = four(1, 1, 1, 1);
+        FencedRows x = Checks.four(1, 1, 1, 1);
         x.away(1, true);
         CHECKS.throwsIndex("17: a call that throws", x, () -> x.away(48, true));
         CHECKS.throwsArgument("17: another", x, () -> x.weigh(0, 0));

@@ -94,6 +94,17 @@ final class Checks {
         return x;
     }
 
+    /** Rows 0 to 3 in a block of their own, of these weights. */
+    static FencedRows four(int a, int b, int c, int d) {
+        FencedRows x = new FencedRows();
+        x.fence(4, true);
+        x.weigh(0, a);
+        x.weigh(1, b);
+        x.weigh(2, c);
+        x.weigh(3, d);
+        return x;
+    }
+
     /** To be the last call of a test's main method. */
     void end() {
         System.out.println(made + " checks, " + wrong + " wrong");

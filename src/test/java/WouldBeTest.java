@@ -23,19 +23,8 @@ public final class WouldBeTest {
         CHECKS.end();
     }
 
-    /** Rows 0 to 3 in a block of their own, of these weights. */
-    private static FencedRows four(int a, int b, int c, int d) {
-        FencedRows x = new FencedRows();
-        x.fence(4, true);
-        x.weigh(0, a);
-        x.weigh(1, b);
-        x.weigh(2, c);
-        x.weigh(3, d);
-        return x;
-    }
-
     private static void promise18IfSought() {
-        FencedRows x = four(1, 1, 1, 1);
+        FencedRows x = Checks.four(1, 1, 1, 1);
         x.lie(0, -1);
         x.tell();
         x.away(20, true);
@@ -60,7 +49,7 @@ public final class WouldBeTest {
     }
 
     private static void promise18Throws() {
-        FencedRows x = four(1, 1, 1, 1);
+        FencedRows x = Checks.four(1, 1, 1, 1);
         CHECKS.throwsState("18: no sums", x, () -> x.ifSought(0, 0));
         for (int way : NO_WAYS) {
             CHECKS.throwsArgument("18: way " + way + ", and no sums", x, () -> x.ifSought(way, 0));
@@ -75,7 +64,7 @@ public final class WouldBeTest {
     }
 
     private static void promise19BestWay() {
-        FencedRows x = four(1, 1, 1, 9);
+        FencedRows x = Checks.four(1, 1, 1, 9);
         CHECKS.is("19: no sums", x.bestWay(), FencedRows.NONE);
         x.away(3, true);
         x.tell();
@@ -137,7 +126,7 @@ public final class WouldBeTest {
     }
 
     private static void promise20Throws() {
-        FencedRows x = four(1, 1, 1, 1);
+        FencedRows x = Checks.four(1, 1, 1, 1);
         for (int k : NO_BLOCKS) {
             CHECKS.throwsIndex("20: block " + k, x, () -> x.looks(k, 0, 0));
             CHECKS.throwsIndex("20: block " + k + ", and no such way", x, () -> x.looks(k, 3, 2));
@@ -246,7 +235,7 @@ public final class WouldBeTest {
     }
 
     private static int canBe(int lie, boolean... away) {
-        FencedRows x = four(2, 5, 5, 90);
+        FencedRows x = Checks.four(2, 5, 5, 90);
         for (int r = 0; r < away.length; r++) {
             x.away(r, away[r]);
         }
@@ -272,7 +261,7 @@ public final class WouldBeTest {
         CHECKS.is("23: 14", canBe(2, false, false, false, true), 0);
         CHECKS.is("23: 92", canBe(2, true, true, true, false), 1);
         CHECKS.is("23: 91", canBe(1, true, true, true, false), 0);
-        FencedRows later = four(2, 5, 5, 90);
+        FencedRows later = Checks.four(2, 5, 5, 90);
         later.tell();
         later.weigh(0, 1);
         CHECKS.is("23: by the weights now", later.canBe(0), 0);
@@ -295,7 +284,7 @@ public final class WouldBeTest {
     }
 
     private static void promise23Sixty4() {
-        FencedRows x = four(64, 64, 1, 1);
+        FencedRows x = Checks.four(64, 64, 1, 1);
         x.away(2, true);
         x.away(3, true);
         x.tell();
@@ -323,7 +312,7 @@ public final class WouldBeTest {
     }
 
     private static void promise23Throws() {
-        FencedRows x = four(1, 1, 1, 1);
+        FencedRows x = Checks.four(1, 1, 1, 1);
         CHECKS.throwsState("23: no sums", x, () -> x.canBe(0));
         for (int k : NO_BLOCKS) {
             CHECKS.throwsIndex("23: block " + k + ", and no sums", x, () -> x.canBe(k));
@@ -337,7 +326,7 @@ public final class WouldBeTest {
     }
 
     private static void promise24Farthest() {
-        FencedRows x = four(1, 1, 1, 1);
+        FencedRows x = Checks.four(1, 1, 1, 1);
         x.fence(10, true);
         CHECKS.is("24: no sums", x.farthest(), FencedRows.NONE);
         x.tell();
