@@ -792,14 +792,14 @@ public final class FencedRows {
             return ROWS;
         }
 
-        /** The least cost of all trees over the block: that of each stretch from those of the shorter ones. */
+        /**
+         * The least cost of all trees over the block: that of each stretch from those
+         * of the shorter ones. One row costs no look, so its cost is never set.
+         */
         int least(Meadow meadow, int k) {
             int first = meadow.firstRow(k);
             int end = meadow.firstRow(k + 1);
             halving.measure(meadow, BY_LOSSES);
-            for (int r = first; r < end; r++) {
-                setCost(r, r + 1, 0);
-            }
             for (int length = 2; length <= end - first; length++) {
                 for (int from = first; from + length <= end; from++) {
                     setCost(from, from + length, leastSplit(from, from + length));

@@ -1,477 +1,511 @@
-/** Promises 9 to 17. */
+import java.util.List;
+
+/** Promises 9 to 16. */
 public final class ActionsTest {
+    static final List<String> SECTIONS = List.of("Promise 9", "Promise 10", "Promise 11", "Promise 12", "Promise 13",
+            "Promise 14", "Promise 15", "Promise 16");
+
     private static final Checks CHECKS = new Checks();
+    private static final int LEAST = Integer.MIN_VALUE;
+    private static final int GREATEST = Integer.MAX_VALUE;
+    private static final int[] NO_ROWS = {-1, 48, 100, LEAST, GREATEST};
 
-    public static void main(String[] args) {
-        promise9Weigh();
-        promise10Away();
-        promise11Fence();
-        promise11ForgetsSums();
-        promise12Spread();
-        promise12Throws();
-        promise13Lie();
-        promise14Tell();
-        promise15Halves();
-        promise15Lies();
-        promise15OutOfDate();
-        promise15Ways();
-        promise15Untrusted();
-        promise15Losses();
-        promise15Throws();
-        promise16Trust();
-        promise17Undo();
-        promise17EachAction();
-        promise17Forgets();
-        CHECKS.end();
+    public static void main(String[] args) throws Exception {
+        Sentences s = new Sentences(CHECKS, SECTIONS);
+        promises9And10(s);
+        promises11And12(s);
+        promises13And14(s);
+        promises15And16(s);
+        s.end();
     }
 
-    private static final int[] NO_ROWS = {-1, 48, 100, Integer.MIN_VALUE, Integer.MAX_VALUE};
+    private static void promises9And10(Sentences s) {
+        s.in("Promise 9");
+        s.holds("Changes the weight of a row. r: row", ActionsTest::promise9Changes);
+        s.holds("w: 1 to 99", ActionsTest::promise9Weights);
+        s.holds("Returns the previous one.", ActionsTest::promise9Previous);
+        s.holds("Throws IndexOutOfBoundsException if there is no such row", ActionsTest::promise9NoRow);
+        s.holds("Throws IllegalArgumentException if w is out of range", ActionsTest::promise9NoWeight);
+        s.in("Promise 10");
+        s.holds("Lets a row go away, or come back. r: row away: whether it is away then", ActionsTest::promise10Goes);
+        s.holds("Returns the rows that are away then, how many.", ActionsTest::promise10HowMany);
+        s.holds("Throws IndexOutOfBoundsException if there is no such row", ActionsTest::promise10NoRow);
+    }
 
-    private static void promise9Weigh() {
+    private static void promises11And12(Sentences s) {
+        s.in("Promise 11");
+        s.holds("Puts a fence ahead of a row, or takes it away.", ActionsTest::promise11Puts);
+        s.holds("r: row, 1 to 47", ActionsTest::promise11Places);
+        s.holds("put: whether there is a fence then", ActionsTest::promise11Then);
+        s.holds("Returns the blocks then.", ActionsTest::promise11Blocks);
+        s.holds("Throws IndexOutOfBoundsException if there is no such place of a fence", ActionsTest::promise11NoPlace);
+        s.holds("Throws IllegalStateException if one more would be put, and there are 11", ActionsTest::promise11Full);
+        s.in("Promise 12");
+        s.holds("Takes all fences away, and puts others", ActionsTest::promise12Others);
+        s.holds("with g as what balanced(n) tells, from the first row on, each block gets as many rows as its book is"
+                + " at most g.", ActionsTest::promise12AsManyRows);
+        s.holds("(These are n fences or fewer.", ActionsTest::promise12OrFewer);
+        s.holds("No sums are told then, and all lies are 0, also if the fences are as they were.)",
+                ActionsTest::promise12NoSums);
+        s.holds("n: 1 to 11", ActionsTest::promise12Counts);
+        s.holds("Returns the blocks then.", ActionsTest::promise12Blocks);
+        s.holds("Throws IllegalArgumentException if n is out of range", ActionsTest::promise12Throws);
+    }
+
+    private static void promises13And14(Sentences s) {
+        s.in("Promise 13");
+        s.holds("Changes the lie of a block. (A sum that it is told stays as it was told.)",
+                ActionsTest::promise13Changes);
+        s.holds("k: block", ActionsTest::promise13Blocks);
+        s.holds("v: -2 to 2", ActionsTest::promise13Lies);
+        s.holds("Returns the previous one.", ActionsTest::promise13Previous);
+        s.holds("Throws IndexOutOfBoundsException if there is no such block", ActionsTest::promise13NoBlock);
+        s.holds("Throws IllegalArgumentException if v is out of range", ActionsTest::promise13NoLie);
+        s.in("Promise 14");
+        s.holds("Tells sums of all blocks.", ActionsTest::promise14Tells);
+        s.holds("Returns the sums together.", ActionsTest::promise14Together);
+    }
+
+    private static void promises15And16(Sentences s) {
+        s.in("Promise 15");
+        s.holds("Searches. way: 0 to 2", ActionsTest::promise15Searches);
+        s.holds("Returns the looks.", ActionsTest::promise15Looks);
+        s.holds("Throws IllegalArgumentException if way is out of range", ActionsTest::promise15NoWay);
+        s.holds("Throws IllegalStateException if setting 0 is 1 and no sums are told", ActionsTest::promise15NoSums);
+        s.in("Promise 16");
+        s.holds("Changes setting 0.", ActionsTest::promise16Changes);
+        s.holds("v: 0 or 1", ActionsTest::promise16Values);
+        s.holds("Returns the previous one.", ActionsTest::promise16Previous);
+        s.holds("Throws IllegalArgumentException if v is neither 0 nor 1", ActionsTest::promise16Throws);
+    }
+
+    // ---- promises 9 and 10
+
+    private static void promise9Changes() {
+        FencedRows x = Checks.lived();
+        x.weigh(0, 44);
+        x.weigh(47, 55);
+        CHECKS.is("the first row", x.rowOf(0, 0), 44);
+        CHECKS.is("the last row", x.rowOf(47, 0), 55);
+        CHECKS.is("the others", x.about(2), Checks.lived().about(2) + 43 + 54);
+        FencedRows told = Checks.front(1, 1);
+        told.tell();
+        told.weigh(0, 9);
+        CHECKS.is("a told sum stays", told.blockOf(0, 5), 2);
+    }
+
+    private static void promise9Weights() {
         FencedRows x = new FencedRows();
-        CHECKS.is("9: the first weight", x.weigh(0, 99), 1);
-        CHECKS.is("9: the previous", x.weigh(0, 1), 99);
-        CHECKS.is("9: the last row", x.weigh(47, 50), 1);
-        CHECKS.is("9: it weighs", x.rowOf(47, 0), 50);
-        x.tell();
-        x.weigh(5, 9);
-        CHECKS.is("9: sums stay", x.blockOf(0, 5), 97);
+        for (int w : new int[] {1, 2, 98, 99, 1}) {
+            x.weigh(20, w);
+            CHECKS.is("weight " + w, x.rowOf(20, 0), w);
+        }
+    }
+
+    private static void promise9Previous() {
+        FencedRows x = new FencedRows();
+        CHECKS.is("the first", x.weigh(5, 99), 1);
+        CHECKS.is("the second", x.weigh(5, 1), 99);
+        CHECKS.is("the third", x.weigh(5, 1), 1);
+        CHECKS.is("of another row", x.weigh(6, 7), 1);
+        CHECKS.is("as it was", x.weigh(6, 7), 7);
+    }
+
+    private static void promise9NoRow() {
         for (int r : NO_ROWS) {
-            CHECKS.throwsIndex("9: row " + r, x, () -> x.weigh(r, 1));
-            CHECKS.throwsIndex("9: row " + r + ", and no such weight", x, () -> x.weigh(r, 0));
-        }
-        for (int w : new int[] {0, 100, -1, Integer.MIN_VALUE, Integer.MAX_VALUE}) {
-            CHECKS.throwsArgument("9: weight " + w, x, () -> x.weigh(3, w));
+            CHECKS.throwsIndex("row " + r, Checks::lived, x -> x.weigh(r, 1));
+            CHECKS.throwsIndex("row " + r + ", and weight 0", Checks::lived, x -> x.weigh(r, 0));
+            CHECKS.throwsIndex("row " + r + ", and weight 100", Checks::lived, x -> x.weigh(r, 100));
         }
     }
 
-    private static void promise10Away() {
+    private static void promise9NoWeight() {
+        for (int w : new int[] {0, 100, -1, LEAST, GREATEST}) {
+            CHECKS.throwsArgument("weight " + w, Checks::lived, x -> x.weigh(0, w));
+            CHECKS.throwsArgument("weight " + w + " of the last row", Checks::lived, x -> x.weigh(47, w));
+        }
+    }
+
+    private static void promise10Goes() {
         FencedRows x = new FencedRows();
-        CHECKS.is("10: the first", x.away(0, true), 1);
-        CHECKS.is("10: again", x.away(0, true), 1);
-        CHECKS.is("10: the last", x.away(47, true), 2);
-        CHECKS.is("10: one that is there comes back", x.away(5, false), 2);
-        CHECKS.is("10: one comes back", x.away(0, false), 1);
-        CHECKS.is("10: it is there", x.rowOf(0, 1), 0);
-        CHECKS.is("10: the other is not", x.rowOf(47, 1), 1);
+        x.away(0, true);
+        x.away(47, true);
+        x.away(20, true);
+        x.away(20, true);
+        CHECKS.is("the first", x.rowOf(0, 1), 1);
+        CHECKS.is("the last", x.rowOf(47, 1), 1);
+        CHECKS.is("twice", x.rowOf(20, 1), 1);
+        x.away(20, false);
+        x.away(0, false);
+        x.away(0, false);
+        CHECKS.is("back", x.rowOf(20, 1), 0);
+        CHECKS.is("back twice", x.rowOf(0, 1), 0);
+        CHECKS.is("the last still", x.rowOf(47, 1), 1);
+        CHECKS.is("their field", x.about(3), 47);
+    }
+
+    private static void promise10HowMany() {
+        FencedRows x = new FencedRows();
+        CHECKS.is("one that is there comes back", x.away(0, false), 0);
+        for (int r = 0; r < 48; r++) {
+            CHECKS.is("row " + r, x.away(r, true), r + 1);
+        }
+        CHECKS.is("one that is away goes away", x.away(47, true), 48);
+        for (int r = 47; r >= 0; r--) {
+            CHECKS.is("row " + r + " back", x.away(r, false), r);
+        }
+    }
+
+    private static void promise10NoRow() {
         for (int r : NO_ROWS) {
-            CHECKS.throwsIndex("10: row " + r, x, () -> x.away(r, true));
-            CHECKS.throwsIndex("10: row " + r + " back", x, () -> x.away(r, false));
+            CHECKS.throwsIndex("row " + r, Checks::lived, x -> x.away(r, true));
+            CHECKS.throwsIndex("row " + r + " back", Checks::lived, x -> x.away(r, false));
         }
     }
 
-    private static void promise11Fence() {
+    // ---- promises 11 and 12
+
+    private static void promise11Puts() {
         FencedRows x = new FencedRows();
-        CHECKS.is("11: at 1", x.fence(1, true), 2);
-        CHECKS.is("11: at 47", x.fence(47, true), 3);
-        CHECKS.is("11: again", x.fence(47, true), 3);
-        CHECKS.is("11: none to take", x.fence(30, false), 3);
-        CHECKS.is("11: taken", x.fence(1, false), 2);
-        CHECKS.is("11: the blocks", x.blockOf(1, 0), 47);
-        for (int r : new int[] {0, -1, 48, Integer.MIN_VALUE, Integer.MAX_VALUE}) {
-            CHECKS.throwsIndex("11: place " + r, x, () -> x.fence(r, true));
-            CHECKS.throwsIndex("11: place " + r + " taken", x, () -> x.fence(r, false));
-        }
-        for (int r = 10; r < 20; r++) {
-            CHECKS.is("11: at " + r, x.fence(r, true), r - 10 + 3);
-        }
-        CHECKS.throwsState("11: the twelfth", x, () -> x.fence(20, true));
-        CHECKS.throwsIndex("11: the twelfth, nowhere", x, () -> x.fence(48, true));
-        CHECKS.is("11: one that is there is no twelfth", x.fence(47, true), 12);
-        CHECKS.is("11: with eleven, none to take", x.fence(20, false), 12);
-        CHECKS.is("11: with eleven, taken", x.fence(10, false), 11);
-        CHECKS.is("11: room again", x.fence(20, true), 12);
+        x.fence(20, true);
+        x.fence(10, true);
+        CHECKS.is("the second block", x.blockOf(1, 0), 10);
+        CHECKS.is("the third block", x.blockOf(2, 0), 20);
+        x.fence(10, false);
+        CHECKS.is("the second block then", x.blockOf(1, 0), 20);
     }
 
-    private static FencedRows twoLyingBlocks() {
+    private static void promise11Places() {
+        FencedRows x = new FencedRows();
+        x.fence(1, true);
+        x.fence(47, true);
+        CHECKS.is("ahead of 1", x.blockOf(1, 0), 1);
+        CHECKS.is("ahead of 47", x.blockOf(2, 0), 47);
+        x.fence(47, false);
+        x.fence(1, false);
+        CHECKS.is("both taken", x.blockOf(0, 1), 48);
+    }
+
+    private static void promise11Then() {
+        FencedRows x = Checks.front(1, 1);
+        x.fence(2, true);
+        CHECKS.is("put where one stands", x.about(0), 2);
+        x.fence(3, false);
+        CHECKS.is("taken where none stands", x.about(0), 2);
+        CHECKS.is("it stands still", x.blockOf(1, 0), 2);
+        x.fence(2, false);
+        x.fence(2, false);
+        CHECKS.is("taken twice", x.about(0), 1);
+    }
+
+    private static void promise11Blocks() {
+        FencedRows x = new FencedRows();
+        CHECKS.is("none to take", x.fence(1, false), 1);
+        for (int i = 1; i <= 11; i++) {
+            CHECKS.is("put " + i, x.fence(4 * i, true), i + 1);
+        }
+        CHECKS.is("put again", x.fence(44, true), 12);
+        CHECKS.is("none to take of eleven", x.fence(1, false), 12);
+        CHECKS.is("taken", x.fence(44, false), 11);
+    }
+
+    private static void promise11NoPlace() {
+        for (int r : new int[] {0, 48, -1, LEAST, GREATEST}) {
+            CHECKS.throwsIndex("put at " + r, Checks::lived, x -> x.fence(r, true));
+            CHECKS.throwsIndex("taken at " + r, Checks::lived, x -> x.fence(r, false));
+            CHECKS.throwsIndex("put at " + r + ", and there are 11", Checks::fullOfFences, x -> x.fence(r, true));
+        }
+    }
+
+    private static void promise11Full() {
+        for (int r : new int[] {12, 13, 30, 47}) {
+            CHECKS.throwsState("the twelfth at " + r, Checks::fullOfFences, x -> x.fence(r, true));
+            CHECKS.answers("none at " + r + " to take", Checks::fullOfFences, x -> x.fence(r, false), 12);
+        }
+        for (int r = 1; r <= 11; r++) {
+            int at = r;
+            CHECKS.answers("put again at " + r, Checks::fullOfFences, x -> x.fence(at, true), 12);
+            CHECKS.answers("taken at " + r, Checks::fullOfFences, x -> x.fence(at, false), 11);
+        }
+        FencedRows x = Checks.fullOfFences();
+        x.fence(5, false);
+        CHECKS.is("the eleventh again", x.fence(30, true), 12);
+        FencedRows spread = new FencedRows();
+        spread.spread(11);
+        CHECKS.same("eleven by spread", Checks.thrown(spread, y -> y.fence(1, true)),
+                IllegalStateException.class.getName());
+    }
+
+    private static void promise12Others() {
+        FencedRows x = new FencedRows();
+        x.fence(5, true);
+        x.fence(6, true);
+        x.spread(1);
+        CHECKS.is("just one fence", x.about(0), 2);
+        CHECKS.is("it stands in the middle", x.blockOf(1, 0), 24);
+        FencedRows full = Checks.fullOfFences();
+        full.spread(11);
+        for (int k = 0; k < 12; k++) {
+            CHECKS.is("others of eleven, block " + k, full.blockOf(k, 0), 4 * k);
+        }
+    }
+
+    private static void promise12AsManyRows() {
+        FencedRows x = new FencedRows();
+        x.spread(4);
+        int[] due = {0, 10, 20, 30, 40};
+        for (int k = 0; k < due.length; k++) {
+            CHECKS.is("five blocks of 10 or fewer rows, block " + k, x.blockOf(k, 0), due[k]);
+        }
+        FencedRows back = new FencedRows();
+        back.weigh(47, 99);
+        back.spread(1);
+        CHECKS.is("a heavy row at the end stands alone", back.blockOf(1, 0), 47);
+        FencedRows front = new FencedRows();
+        front.weigh(0, 99);
+        front.spread(1);
+        CHECKS.is("a heavy row in front stands alone", front.blockOf(1, 0), 1);
+        FencedRows away = new FencedRows();
+        for (int r = 0; r < 24; r++) {
+            away.away(r, true);
+        }
+        away.spread(1);
+        CHECKS.is("rows that are away weigh, too", away.blockOf(1, 0), 24);
+    }
+
+    private static void promise12OrFewer() {
+        FencedRows heavy = new FencedRows();
+        heavy.weigh(47, 99);
+        CHECKS.is("one of eleven is enough", heavy.spread(11), 2);
+        CHECKS.answers("nine of ten are enough", FencedRows::new, x -> x.spread(10), 10);
+        CHECKS.answers("all eleven are needed", FencedRows::new, x -> x.spread(11), 12);
+    }
+
+    private static void promise12NoSums() {
         FencedRows x = new FencedRows();
         x.fence(24, true);
         x.lie(0, 2);
         x.lie(1, -1);
         x.tell();
-        return x;
+        CHECKS.is("the fence is as it was", x.spread(1) + x.blockOf(1, 0), 2 + 24);
+        CHECKS.is("no sums", x.about(4), 0);
+        CHECKS.is("no lie of block 0", x.blockOf(0, 4), 0);
+        CHECKS.is("no lie of block 1", x.blockOf(1, 4), 0);
+        FencedRows y = new FencedRows();
+        y.lie(0, 1);
+        y.tell();
+        y.spread(3);
+        CHECKS.is("no sums of others", y.about(4), 0);
+        CHECKS.is("no lie of others", y.blockOf(0, 4), 0);
     }
 
-    private static void promise11ForgetsSums() {
-        FencedRows put = twoLyingBlocks();
-        put.fence(40, true);
-        CHECKS.is("11: a fence that comes forgets sums", put.about(4), 0);
-        CHECKS.is("11: and the lie of 0", put.blockOf(0, 4), 0);
-        CHECKS.is("11: and the lie of 1", put.blockOf(1, 4), 0);
-        FencedRows taken = twoLyingBlocks();
-        taken.fence(24, false);
-        CHECKS.is("11: a fence that goes forgets sums", taken.about(4), 0);
-        taken.fence(24, true);
-        CHECKS.is("11: and all lies", taken.blockOf(0, 4) + 10 * taken.blockOf(1, 4), 0);
-        FencedRows same = twoLyingBlocks();
-        same.fence(24, true);
-        same.fence(25, false);
-        CHECKS.is("11: a fence that stays keeps sums", same.about(4), 1);
-        CHECKS.is("11: and lies", same.blockOf(0, 4), 2);
-        CHECKS.is("11: and the sums as told", same.blockOf(1, 5), 23);
+    private static void promise12Counts() {
+        for (int n = 1; n <= 11; n++) {
+            int most = (48 + n) / (n + 1);
+            FencedRows x = new FencedRows();
+            CHECKS.is("spread(" + n + ")", x.spread(n), (48 + most - 1) / most);
+            CHECKS.is("the second block of " + n, x.blockOf(1, 0), most);
+        }
     }
 
-    private static void promise12Spread() {
+    private static void promise12Blocks() {
         FencedRows x = new FencedRows();
-        x.fence(5, true);
-        CHECKS.is("12: one fence", x.spread(1), 2);
-        CHECKS.is("12: in the middle", x.blockOf(1, 0), 24);
-        CHECKS.is("12: eleven fences", x.spread(11), 12);
-        for (int k = 0; k < 12; k++) {
-            CHECKS.is("12: block " + k, x.blockOf(k, 0), 4 * k);
-        }
-        CHECKS.is("12: four fences", x.spread(4), 5);
-        int[] due = {0, 10, 20, 30, 40};
-        for (int k = 0; k < due.length; k++) {
-            CHECKS.is("12: as many rows as fit, block " + k, x.blockOf(k, 0), due[k]);
-        }
-        FencedRows heavy = new FencedRows();
-        heavy.weigh(47, 99);
-        CHECKS.is("12: fewer fences are enough", heavy.spread(11), 2);
-        CHECKS.is("12: the heavy row stands alone", heavy.blockOf(1, 0), 47);
-        FencedRows front = new FencedRows();
-        front.weigh(0, 99);
-        CHECKS.is("12: a heavy row in front", front.spread(1), 2);
-        CHECKS.is("12: it stands alone too", front.blockOf(1, 0), 1);
-        FencedRows same = twoLyingBlocks();
-        CHECKS.is("12: as it was", same.spread(1), 2);
-        CHECKS.is("12: forgets sums though", same.about(4), 0);
-        CHECKS.is("12: and lies", same.blockOf(0, 4), 0);
-        CHECKS.is("12: away rows weigh too", spreadWithAway(), 24);
-    }
-
-    private static int spreadWithAway() {
-        FencedRows x = new FencedRows();
-        for (int r = 0; r < 24; r++) {
-            x.away(r, true);
-        }
-        x.spread(1);
-        return x.blockOf(1, 0);
+        CHECKS.is("one fence", x.spread(1), 2);
+        CHECKS.is("again", x.spread(1), 2);
+        CHECKS.is("eleven fences", x.spread(11), 12);
+        CHECKS.is("fewer again", x.spread(2), 3);
+        CHECKS.is("as about tells", x.about(0), 3);
     }
 
     private static void promise12Throws() {
-        FencedRows x = twoLyingBlocks();
-        for (int n : new int[] {0, 12, -1, Integer.MIN_VALUE, Integer.MAX_VALUE}) {
-            CHECKS.throwsArgument("12: spread(" + n + ")", x, () -> x.spread(n));
+        for (int n : new int[] {0, 12, -1, LEAST, GREATEST}) {
+            CHECKS.throwsArgument("spread(" + n + ")", Checks::lived, x -> x.spread(n));
         }
     }
 
-    private static void promise13Lie() {
-        FencedRows x = new FencedRows();
-        x.fence(10, true);
+    // ---- promises 13 and 14
+
+    private static void promise13Changes() {
+        FencedRows x = Checks.front(1, 1);
         x.tell();
-        CHECKS.is("13: the first lie", x.lie(1, -2), 0);
-        CHECKS.is("13: the previous", x.lie(1, 2), -2);
-        CHECKS.is("13: it lies", x.blockOf(1, 4), 2);
-        CHECKS.is("13: the other does not", x.blockOf(0, 4), 0);
-        CHECKS.is("13: a told sum stays", x.blockOf(1, 5), 38);
-        for (int k : new int[] {-1, 2, 11, 12, Integer.MIN_VALUE, Integer.MAX_VALUE}) {
-            CHECKS.throwsIndex("13: block " + k, x, () -> x.lie(k, 0));
-            CHECKS.throwsIndex("13: block " + k + ", and no such lie", x, () -> x.lie(k, 3));
-        }
-        for (int v : new int[] {-3, 3, Integer.MIN_VALUE, Integer.MAX_VALUE}) {
-            CHECKS.throwsArgument("13: lie " + v, x, () -> x.lie(0, v));
-        }
-        FencedRows twelve = new FencedRows();
-        twelve.spread(11);
-        CHECKS.is("13: block 11", twelve.lie(11, 1), 0);
-        CHECKS.is("13: block 11 lies", twelve.blockOf(11, 4), 1);
+        x.lie(1, 2);
+        CHECKS.is("the lie", x.blockOf(1, 4), 2);
+        CHECKS.is("of the other block", x.blockOf(0, 4), 0);
+        CHECKS.is("the sum as it was told", x.blockOf(1, 5), 46);
+        x.tell();
+        CHECKS.is("the sum that is told then", x.blockOf(1, 5), 48);
+        x.lie(1, 0);
+        CHECKS.is("the lie goes, the sum stays", x.blockOf(1, 5), 48);
+        CHECKS.is("sums are told still", x.about(4), 1);
     }
 
-    private static void promise14Tell() {
+    private static void promise13Blocks() {
+        CHECKS.answers("the only one", FencedRows::new, x -> x.lie(0, 1) + 10 * x.blockOf(0, 4), 10);
+        for (int k = 0; k <= 11; k++) {
+            int block = k;
+            CHECKS.answers("block " + k, Checks::fullOfFences, x -> x.lie(block, 2) + 10 * x.blockOf(block, 4), 20);
+        }
+    }
+
+    private static void promise13Lies() {
         FencedRows x = new FencedRows();
-        CHECKS.is("14: all are there", x.tell(), 48);
-        x.fence(2, true);
+        for (int v = -2; v <= 2; v++) {
+            x.lie(0, v);
+            CHECKS.is("lie " + v, x.blockOf(0, 4), v);
+        }
+    }
+
+    private static void promise13Previous() {
+        FencedRows x = Checks.front(1);
+        CHECKS.is("the first", x.lie(0, -2), 0);
+        CHECKS.is("the second", x.lie(0, 2), -2);
+        CHECKS.is("the third", x.lie(0, 2), 2);
+        CHECKS.is("of the other block", x.lie(1, 1), 0);
+        x.fence(10, true);
+        CHECKS.is("behind a fence", x.lie(0, 1), 0);
+    }
+
+    private static void promise13NoBlock() {
+        for (int k : new int[] {-1, 3, 11, 12, LEAST, GREATEST}) {
+            CHECKS.throwsIndex("block " + k, Checks::lived, x -> x.lie(k, 0));
+            CHECKS.throwsIndex("block " + k + ", and lie 3", Checks::lived, x -> x.lie(k, 3));
+            CHECKS.throwsIndex("block " + k + ", and lie -3", Checks::lived, x -> x.lie(k, -3));
+        }
+        CHECKS.throwsIndex("block 1 of one", FencedRows::new, x -> x.lie(1, 0));
+        CHECKS.throwsIndex("block 12 of twelve", Checks::fullOfFences, x -> x.lie(12, 0));
+    }
+
+    private static void promise13NoLie() {
+        for (int v : new int[] {-3, 3, LEAST, GREATEST}) {
+            CHECKS.throwsArgument("lie " + v, Checks::lived, x -> x.lie(0, v));
+            CHECKS.throwsArgument("lie " + v + " of the last block", Checks::lived, x -> x.lie(2, v));
+        }
+    }
+
+    private static void promise14Tells() {
+        FencedRows x = Checks.fullOfFences();
+        x.away(3, true);
+        x.away(47, true);
+        x.lie(5, 2);
+        x.tell();
+        for (int k = 0; k < 12; k++) {
+            int due = k == 3 ? 0 : k == 5 ? 3 : k == 11 ? 36 : 1;
+            CHECKS.is("the sum of block " + k, x.blockOf(k, 5), due);
+        }
+        x.away(3, false);
+        x.tell();
+        CHECKS.is("told anew", x.blockOf(3, 5), 1);
+    }
+
+    private static void promise14Together() {
+        CHECKS.answers("one block", FencedRows::new, FencedRows::tell, 48);
+        FencedRows x = Checks.front(1, 1);
         x.weigh(5, 20);
         x.away(4, true);
-        CHECKS.is("14: two blocks", x.tell(), 48 + 19 - 1);
+        CHECKS.is("two blocks", x.tell(), 48 + 19 - 1);
         x.lie(1, 2);
-        CHECKS.is("14: with a lie", x.tell(), 48 + 19 - 1 + 2);
-        CHECKS.is("14: of its block", x.blockOf(1, 5), 46 + 19 - 1 + 2);
+        CHECKS.is("with a lie", x.tell(), 48 + 19 - 1 + 2);
         x.away(0, true);
         x.away(1, true);
         x.lie(0, -2);
-        x.lie(1, -2);
-        CHECKS.is("14: below 0", x.tell(), -2 + 46 + 19 - 1 - 2);
-        CHECKS.is("14: a block below 0", x.blockOf(0, 5), -2);
+        CHECKS.is("one below 0", x.tell(), -2 + 46 + 19 - 1 + 2);
         x.fence(2, false);
-        CHECKS.is("14: fewer blocks than were told before", x.tell(), 46 + 19 - 1);
+        CHECKS.is("fewer blocks than before", x.tell(), 46 + 19 - 1);
         FencedRows none = new FencedRows();
         for (int r = 0; r < 48; r++) {
             none.away(r, true);
         }
+        CHECKS.is("nobody there", none.tell(), 0);
         none.lie(0, -2);
-        CHECKS.is("14: all together below 0", none.tell(), -2);
+        CHECKS.is("all together below 0", none.tell(), -2);
     }
 
-    /** The rows 0 to 3 that were taken, as a number of bits; -1 if others were, too. */
-    private static int taken(FencedRows x) {
-        int bits = 0;
-        for (int r = 0; r < 4; r++) {
-            bits += x.rowOf(r, 4) << r;
-        }
-        return Integer.bitCount(bits) == x.about(6) ? bits : -1;
-    }
+    // ---- promises 15 and 16
 
-    private static void seeks(String what, FencedRows x, int way, int looks, int rows) {
-        CHECKS.is("15: looks, " + what, x.seek(way), looks);
-        CHECKS.is("15: taken, " + what, taken(x), rows);
-    }
-
-    private static void promise15Halves() {
-        FencedRows none = Checks.four(1, 1, 1, 1);
-        none.tell();
-        seeks("nobody away", none, 0, 0, 0);
-        int[] alone = {2, 2, 2, 2};
-        for (int r = 0; r < 4; r++) {
-            FencedRows x = Checks.four(1, 1, 1, 1);
-            x.away(r, true);
-            x.tell();
-            seeks("row " + r, x, 0, alone[r], 1 << r);
-        }
-        FencedRows left = Checks.four(1, 1, 1, 1);
-        left.away(0, true);
-        left.away(1, true);
-        left.tell();
-        seeks("a whole half", left, 0, 1, 3);
-        FencedRows all = Checks.four(1, 1, 1, 1);
-        for (int r = 0; r < 4; r++) {
-            all.away(r, true);
-        }
-        all.tell();
-        seeks("a whole block", all, 0, 0, 15);
-        FencedRows two = Checks.four(1, 1, 1, 1);
-        two.away(1, true);
-        two.away(2, true);
-        two.tell();
-        seeks("one in each half", two, 0, 3, 6);
-        FencedRows blocks = Checks.four(1, 1, 1, 1);
-        blocks.fence(6, true);
-        blocks.away(0, true);
-        blocks.away(5, true);
-        blocks.tell();
-        CHECKS.is("15: looks of two blocks", blocks.seek(0), 2 + 1);
-        CHECKS.is("15: found in the second", blocks.rowOf(5, 4), 1);
-        CHECKS.is("15: none was missed", blocks.about(8), 0);
-    }
-
-    private static void promise15Lies() {
-        FencedRows less = Checks.four(1, 1, 1, 1);
-        less.lie(0, -1);
-        less.tell();
-        seeks("nobody, a lie of -1", less, 0, 2, 8);
-        CHECKS.is("15: wrongly", less.about(7), 1);
-        CHECKS.is("15: missed", less.about(8), 0);
-        FencedRows more = Checks.four(1, 1, 1, 1);
-        more.lie(0, 1);
-        more.away(1, true);
-        more.tell();
-        seeks("a lie that hides it", more, 0, 0, 0);
-        CHECKS.is("15: it was missed", more.about(8), 1);
-        FencedRows heavy = Checks.four(1, 1, 1, 2);
-        heavy.lie(0, -1);
-        heavy.tell();
-        seeks("a look at one row that is there", heavy, 0, 3, 0);
-        FencedRows below = Checks.four(1, 1, 1, 1);
-        below.lie(0, -2);
-        for (int r = 0; r < 4; r++) {
-            below.away(r, true);
-        }
-        below.tell();
-        seeks("more lacking than the book", below, 0, 3, 15);
-        FencedRows above = Checks.four(1, 1, 1, 1);
-        above.lie(0, 2);
-        above.tell();
-        seeks("a sum above the book", above, 0, 0, 0);
-    }
-
-    private static void promise15OutOfDate() {
-        FencedRows late = Checks.four(1, 1, 1, 1);
-        late.tell();
-        late.away(2, true);
-        seeks("away since the telling", late, 0, 0, 0);
-        CHECKS.is("15: missed since then", late.about(8), 1);
-        FencedRows look = Checks.four(1, 1, 1, 2);
-        look.lie(0, -1);
-        look.tell();
-        look.away(3, true);
-        seeks("a look at one row that is away", look, 0, 3, 8);
-        CHECKS.is("15: not wrongly", look.about(7), 0);
-        FencedRows moved = Checks.four(1, 1, 1, 1);
-        moved.away(3, true);
-        moved.tell();
-        moved.away(0, true);
-        moved.away(1, true);
-        seeks("the left has more than is lacking", moved, 0, 1, 3);
-        CHECKS.is("15: the right is not searched", moved.about(8), 1);
-        FencedRows weighs = Checks.four(1, 1, 1, 1);
-        weighs.tell();
-        weighs.weigh(2, 3);
-        seeks("heavier since the telling", weighs, 0, 3, 0);
-    }
-
-    private static void promise15Ways() {
-        FencedRows x = Checks.four(1, 1, 1, 9);
+    /** Four rows that weigh 1, 1, 1 and 9, of which the last is away and told. */
+    private static FencedRows uneven() {
+        FencedRows x = Checks.front(1, 1, 1, 9);
         x.away(3, true);
         x.tell();
-        CHECKS.is("15: by rows", x.ifSought(0, 0), 2);
-        CHECKS.is("15: by weights", x.ifSought(1, 0), 1);
-        CHECKS.is("15: by losses, none yet", x.ifSought(2, 0), 2);
-        x.seek(0);
-        CHECKS.is("15: by losses, 1, 1, 1, 2", x.ifSought(2, 0), 2);
-        x.seek(0);
-        CHECKS.is("15: by losses, 1, 1, 1, 3", x.ifSought(2, 0), 1);
-        FencedRows tie = new FencedRows();
-        tie.fence(3, true);
-        tie.away(0, true);
-        tie.tell();
-        CHECKS.is("15: of two places the least, row 0", tie.seek(0), 1);
-        tie.away(0, false);
-        tie.away(2, true);
-        tie.tell();
-        CHECKS.is("15: of two places the least, row 2", tie.seek(0), 2);
+        return x;
     }
 
-    private static void promise15Untrusted() {
-        FencedRows x = Checks.four(1, 1, 1, 1);
-        x.trust(0);
-        seeks("a look at each block", x, 0, 2, 0);
-        x.away(1, true);
-        seeks("and the halves", x, 0, 2 + 2, 2);
-        x.lie(0, 1);
-        x.tell();
-        seeks("lies do not matter", x, 0, 2 + 2, 2);
-        FencedRows twelve = new FencedRows();
-        twelve.spread(11);
-        twelve.trust(0);
-        CHECKS.is("15: twelve looks at twelve blocks", twelve.seek(2), 12);
-    }
-
-    private static void promise15Losses() {
-        FencedRows x = new FencedRows();
-        x.away(0, true);
-        x.away(47, true);
-        x.trust(0);
-        for (int i = 1; i <= 101; i++) {
-            x.seek(0);
-            CHECKS.is("15: losses of row 0", x.rowOf(0, 2), Math.min(99, i));
-            CHECKS.is("15: losses of row 47", x.rowOf(47, 2), Math.min(99, i));
-        }
-        CHECKS.is("15: others have none", x.about(10), 2 * 99);
-        FencedRows first = Checks.four(1, 1, 1, 1);
-        first.away(3, true);
-        first.tell();
-        first.seek(2);
-        CHECKS.is("15: losses come behind the search", first.about(5), 2);
-    }
-
-    private static void promise15Throws() {
-        FencedRows x = Checks.four(1, 1, 1, 1);
-        for (int way : new int[] {-1, 3, Integer.MIN_VALUE, Integer.MAX_VALUE}) {
-            CHECKS.throwsArgument("15: way " + way + ", and no sums", x, () -> x.seek(way));
-        }
-        for (int way = 0; way < 3; way++) {
+    private static void promise15Searches() {
+        int[] due = {2, 1, 2};
+        for (int way = 0; way <= 2; way++) {
             int w = way;
-            CHECKS.throwsState("15: no sums, way " + way, x, () -> x.seek(w));
+            CHECKS.answers("way " + way, ActionsTest::uneven, x -> x.seek(w), due[way]);
+            CHECKS.answers("way " + way + " takes the row", ActionsTest::uneven, x -> x.seek(w) * 0 + x.rowOf(3, 4), 1);
         }
-        x.trust(0);
-        CHECKS.is("15: no sums, but they are not trusted", x.seek(0), 2);
-        CHECKS.throwsArgument("15: way 3, untrusted", x, () -> x.seek(3));
-        x.trust(1);
-        x.tell();
-        CHECKS.throwsArgument("15: way 3, told", x, () -> x.seek(3));
+        FencedRows losses = uneven();
+        losses.seek(0);
+        CHECKS.is("way 2, losses of 1", losses.seek(2), 2);
+        CHECKS.is("way 2, losses of 2", losses.seek(2), 1);
+    }
+
+    private static void promise15Looks() {
+        CHECKS.answers("none", () -> {
+            FencedRows x = new FencedRows();
+            x.tell();
+            return x;
+        }, x -> x.seek(0), 0);
+        FencedRows x = uneven();
+        CHECKS.is("of the first search", x.seek(0), 2);
+        CHECKS.is("of the second search alone", x.seek(1), 1);
+        CHECKS.is("both together", x.about(5), 3);
+    }
+
+    private static void promise15NoWay() {
+        for (int way : new int[] {-1, 3, LEAST, GREATEST}) {
+            CHECKS.throwsArgument("way " + way, ActionsTest::uneven, x -> x.seek(way));
+            CHECKS.throwsArgument("way " + way + ", untrusted", Checks::lived, x -> x.seek(way));
+            CHECKS.throwsArgument("way " + way + ", and no sums", FencedRows::new, x -> x.seek(way));
+        }
+    }
+
+    private static void promise15NoSums() {
+        for (int way = 0; way <= 2; way++) {
+            int w = way;
+            CHECKS.throwsState("way " + way, () -> Checks.front(1, 1), x -> x.seek(w));
+            CHECKS.answers("setting 0 is 0, way " + way, () -> Checks.front(1, 1), x -> x.trust(0) * 0 + x.seek(w), 2);
+        }
+        FencedRows x = uneven();
+        CHECKS.is("sums are told", x.seek(0), 2);
         x.fence(4, false);
-        CHECKS.throwsState("15: no sums any more", x, () -> x.seek(0));
+        CHECKS.same("no sums any more", Checks.thrown(x, y -> y.seek(0)), IllegalStateException.class.getName());
     }
 
-    private static void promise16Trust() {
+    private static void promise16Changes() {
+        FencedRows x = uneven();
+        x.trust(0);
+        CHECKS.is("setting 0", x.about(9), 0);
+        CHECKS.is("sums are told still", x.about(4), 1);
+        CHECKS.is("a look at each block", x.seek(1), 2 + 1);
+        x.trust(1);
+        CHECKS.is("setting 0 again", x.about(9), 1);
+        CHECKS.is("none at the blocks", x.seek(1), 1);
+    }
+
+    private static void promise16Values() {
         FencedRows x = new FencedRows();
-        CHECKS.is("16: at first 1", x.trust(0), 1);
-        CHECKS.is("16: then 0", x.trust(0), 0);
-        CHECKS.is("16: it is 0", x.about(9), 0);
-        CHECKS.is("16: back", x.trust(1), 0);
-        CHECKS.is("16: it is 1", x.about(9), 1);
-        for (int v : new int[] {-1, 2, Integer.MIN_VALUE, Integer.MAX_VALUE}) {
-            CHECKS.throwsArgument("16: trust(" + v + ")", x, () -> x.trust(v));
+        for (int v : new int[] {0, 0, 1, 1, 0}) {
+            x.trust(v);
+            CHECKS.is("setting 0", x.about(9), v);
         }
     }
 
-    private static void promise17Undo() {
+    private static void promise16Previous() {
         FencedRows x = new FencedRows();
-        CHECKS.throwsState("17: nothing yet", x, x::undo);
-        for (int i = 1; i <= 20; i++) {
-            x.weigh(0, i);
+        CHECKS.is("at first", x.trust(0), 1);
+        CHECKS.is("then", x.trust(0), 0);
+        CHECKS.is("back", x.trust(1), 0);
+        CHECKS.is("as it was", x.trust(1), 1);
+    }
+
+    private static void promise16Throws() {
+        for (int v : new int[] {-1, 2, LEAST, GREATEST}) {
+            CHECKS.throwsArgument("trust(" + v + ")", Checks::lived, x -> x.trust(v));
+            CHECKS.throwsArgument("trust(" + v + ") of a new object", FencedRows::new, x -> x.trust(v));
         }
-        for (int i = 1; i <= 14; i++) {
-            CHECKS.is("17: still remembered", x.undo(), 14 - i);
-            CHECKS.is("17: the state then", x.rowOf(0, 0), 20 - i);
-        }
-        CHECKS.throwsState("17: fourteen at most", x, x::undo);
-        x.away(5, true);
-        x.away(5, true);
-        CHECKS.is("17: also if nothing becomes different", x.undo(), 1);
-        CHECKS.is("17: the row is away still", x.about(1), 1);
-        CHECKS.is("17: undo is no action", x.undo(), 0);
-        CHECKS.is("17: the row is back", x.about(1), 0);
-        CHECKS.throwsState("17: nothing more", x, x::undo);
-    }
-
-    private interface Action {
-        void on(FencedRows x);
-    }
-
-    private static void undone(String what, Action action) {
-        FencedRows x = Checks.four(3, 5, 7, 9);
-        x.away(1, true);
-        x.away(40, true);
-        x.lie(0, 1);
-        x.tell();
-        x.seek(1);
-        x.away(2, true);
-        Object before = Checks.seen(x);
-        action.on(x);
-        CHECKS.is("17: still remembered behind " + what, x.undo(), 11);
-        CHECKS.same("17: taken back, " + what, Checks.seen(x), before);
-    }
-
-    private static void promise17EachAction() {
-        undone("weigh", x -> x.weigh(0, 99));
-        undone("weigh as it was", x -> x.weigh(0, 3));
-        undone("away", x -> x.away(0, true));
-        undone("away as it was", x -> x.away(2, true));
-        undone("fence", x -> x.fence(30, true));
-        undone("fence taken", x -> x.fence(4, false));
-        undone("fence as it was", x -> x.fence(4, true));
-        undone("spread", x -> x.spread(3));
-        undone("lie", x -> x.lie(1, -2));
-        undone("lie as it was", x -> x.lie(1, 0));
-        undone("tell", FencedRows::tell);
-        undone("seek", x -> x.seek(2));
-        undone("trust", x -> x.trust(0));
-        undone("trust as it was", x -> x.trust(1));
-    }
-
-    /** Calls that throw, questions and slots are not remembered. */
-    private static void promise17Forgets() {
-        FencedRows x = Checks.four(1, 1, 1, 1);
-        x.away(1, true);
-        CHECKS.throwsIndex("17: a call that throws", x, () -> x.away(48, true));
-        CHECKS.throwsArgument("17: another", x, () -> x.weigh(0, 0));
-        CHECKS.throwsState("17: a third", x, () -> x.seek(0));
-        CHECKS.throwsArgument("17: a fourth", x, () -> x.trust(2));
-        CHECKS.throwsArgument("17: a fifth", x, () -> x.spread(0));
-        CHECKS.throwsIndex("17: a sixth", x, () -> x.lie(9, 0));
-        CHECKS.throwsIndex("17: a seventh", x, () -> x.fence(0, true));
-        x.balanced(3);
-        x.bestWay();
-        x.simulate(5L, 60);
-        x.runScript(2, 1010140000L);
-        x.looks(0, 0, 0);
-        x.leastLooks(0);
-        x.save(0);
-        x.append('M');
-        x.clearText();
-        CHECKS.is("17: none of them is remembered", x.undo(), 5);
-        CHECKS.is("17: the last action is taken back", x.about(1), 0);
     }
 }

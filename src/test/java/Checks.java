@@ -1,25 +1,38 @@
 import java.util.ArrayList;
 import java.util.List;
 
-/** Counts and prints what is not as due. */
+/**
+ * Counts and prints what is not as due. No object is asked more than 512 times
+ * here, since what later calls answer is free: what must stay as it was is
+ * compared on two objects that were made alike.
+ */
 final class Checks {
-    /** A call that may throw. */
-    interface Call {
-        long answer();
+    /** Makes an object by a few calls, always the same ones. */
+    interface Maker {
+        FencedRows made();
     }
 
-    private static final Class<? extends RuntimeException> INDEX = IndexOutOfBoundsException.class;
-    private static final Class<? extends RuntimeException> ARGUMENT = IllegalArgumentException.class;
-    private static final Class<? extends RuntimeException> STATE = IllegalStateException.class;
+    /** A call, or some. */
+    interface Use {
+        long on(FencedRows x);
+    }
+
+    private static final String NOTHING = "nothing";
 
     private int made = 0;
     private int wrong = 0;
+    private String sentence = "";
+
+    /** What is printed ahead of all that is wrong from here on. */
+    void under(String of) {
+        sentence = of;
+    }
 
     void is(String what, long got, long due) {
         made++;
         if (got != due) {
             wrong++;
-            System.out.println(what + " answered " + got + ", due is " + due);
+            System.out.println(sentence + what + " answered " + got + ", due is " + due);
         }
     }
 
@@ -27,58 +40,101 @@ final class Checks {
         made++;
         if (!got.equals(due)) {
             wrong++;
-            System.out.println(what + ":\n  got " + got + "\n  due " + due);
+            System.out.println(sentence + what + ":\n  got " + got + "\n  due " + due);
         }
+    }
+
+    void differ(String what, Object got, Object other) {
+        yes(what + " is another", !got.equals(other));
     }
 
     void yes(String what, boolean holds) {
         is(what, holds ? 1 : 0, 1);
     }
 
-    void throwsIndex(String what, FencedRows x, Call call) {
-        throwsAndKeeps(what, x, call, INDEX);
+    void answers(String what, Maker maker, Use use, long due) {
+        is(what, use.on(maker.made()), due);
     }
 
-    void throwsArgument(String what, FencedRows x, Call call) {
-        throwsAndKeeps(what, x, call, ARGUMENT);
+    void throwsIndex(String what, Maker maker, Use use) {
+        throwsAndKeeps(what, maker, use, IndexOutOfBoundsException.class);
     }
 
-    void throwsState(String what, FencedRows x, Call call) {
-        throwsAndKeeps(what, x, call, STATE);
+    void throwsArgument(String what, Maker maker, Use use) {
+        throwsAndKeeps(what, maker, use, IllegalArgumentException.class);
     }
 
-    private void throwsAndKeeps(String what, FencedRows x, Call call, Class<? extends RuntimeException> due) {
-        List<Long> before = seen(x);
-        String got = "nothing";
+    void throwsState(String what, Maker maker, Use use) {
+        throwsAndKeeps(what, maker, use, IllegalStateException.class);
+    }
+
+    private void throwsAndKeeps(String what, Maker maker, Use use, Class<? extends RuntimeException> due) {
+        FencedRows x = maker.made();
+        same(what + " throws", thrown(x, use), due.getName());
+        same(what + " changes nothing", whole(x), whole(maker.made()));
+    }
+
+    void throwsNothing(String what, Maker maker, Use use) {
+        same(what + " throws", thrown(maker.made(), use), NOTHING);
+    }
+
+    /** That a call answers, and leaves the state, what is remembered, the slots and the text. */
+    void keeps(String what, Maker maker, Use use) {
+        FencedRows x = maker.made();
+        same(what + " throws", thrown(x, use), NOTHING);
+        same(what + " changes nothing", whole(x), whole(maker.made()));
+    }
+
+    static String thrown(FencedRows x, Use use) {
         try {
-            call.answer();
+            use.on(x);
         } catch (RuntimeException e) {
-            got = e.getClass().getName();
+            return e.getClass().getName();
         }
-        same(what + " throws", got, due.getName());
-        same(what + " changes nothing", seen(x), before);
+        return NOTHING;
     }
 
-    /** All that can be asked of the state without changing it. */
-    static List<Long> seen(FencedRows x) {
-        List<Long> seen = new ArrayList<>();
-        for (int what = 0; what <= 10; what++) {
-            seen.add((long) x.about(what));
-        }
+    /** The state, by some 240 calls that change nothing. */
+    static List<Integer> seen(FencedRows x) {
+        List<Integer> seen = glance(x);
         for (int r = 0; r < 48; r++) {
-            for (int what = 0; what <= 4; what++) {
-                seen.add((long) x.rowOf(r, what));
+            for (int what : new int[] {0, 1, 2, 4}) {
+                seen.add(x.rowOf(r, what));
             }
         }
-        int blocks = x.about(0);
-        int whats = x.about(4) == 1 ? 6 : 5;
-        for (int k = 0; k < blocks; k++) {
-            for (int what = 0; what < whats; what++) {
-                seen.add((long) x.blockOf(k, what));
-            }
+        for (int k = 0; k < seen.get(0); k++) {
+            seen.add(x.blockOf(k, 0));
+            seen.add(x.blockOf(k, 4));
+            seen.add(seen.get(4) == 1 ? x.blockOf(k, 5) : 0);
         }
-        seen.add((long) x.errorPosition());
         return seen;
+    }
+
+    /** What about() tells. */
+    static List<Integer> glance(FencedRows x) {
+        List<Integer> seen = new ArrayList<>();
+        for (int what = 0; what <= 10; what++) {
+            seen.add(x.about(what));
+        }
+        return seen;
+    }
+
+    /** The state, the states that are remembered, the save slots and the text, by some 450 calls that use them up. */
+    static List<Object> whole(FencedRows x) {
+        List<Object> whole = new ArrayList<>(seen(x));
+        for (int i = 0; i < 15 && thrown(x, FencedRows::undo).equals(NOTHING); i++) {
+            whole.add(glance(x));
+        }
+        for (int slot = 0; slot < 2; slot++) {
+            int s = slot;
+            whole.add(thrown(x, y -> y.restore(s)));
+            whole.add(glance(x));
+        }
+        whole.add(x.errorPosition());
+        whole.add(thrown(x, FencedRows::load));
+        whole.add(glance(x));
+        whole.add(x.clearText());
+        return whole;
     }
 
     static void type(FencedRows x, String text) {
@@ -87,21 +143,53 @@ final class Checks {
         }
     }
 
-    static FencedRows loaded(String text) {
+    static FencedRows typed(String text) {
         FencedRows x = new FencedRows();
         type(x, text);
+        return x;
+    }
+
+    static FencedRows loaded(String text) {
+        FencedRows x = typed(text);
         x.load();
         return x;
     }
 
-    /** Rows 0 to 3 in a block of their own, of these weights. */
-    static FencedRows four(int a, int b, int c, int d) {
+    /** As many rows as there are weights, in a block of their own at the front. */
+    static FencedRows front(int... weights) {
         FencedRows x = new FencedRows();
+        x.fence(weights.length, true);
+        for (int r = 0; r < weights.length; r++) {
+            x.weigh(r, weights[r]);
+        }
+        return x;
+    }
+
+    /** As many fences as there can be, ahead of the rows 1 to 11. */
+    static FencedRows fullOfFences() {
+        FencedRows x = new FencedRows();
+        for (int r = 1; r <= 11; r++) {
+            x.fence(r, true);
+        }
+        return x;
+    }
+
+    /** A meadow in which nothing is as in a new object. */
+    static FencedRows lived() {
+        FencedRows x = typed("Mw0507a06s02n");
         x.fence(4, true);
-        x.weigh(0, a);
-        x.weigh(1, b);
-        x.weigh(2, c);
-        x.weigh(3, d);
+        x.fence(30, true);
+        x.weigh(3, 2);
+        x.away(1, true);
+        x.lie(0, -1);
+        x.tell();
+        x.save(0);
+        x.seek(2);
+        x.away(2, true);
+        x.lie(2, 1);
+        x.trust(0);
+        x.save(1);
+        x.weigh(40, 60);
         return x;
     }
 

@@ -7,12 +7,12 @@ public final class RoomTest {
     private static final ThreadMXBean THREADS = (ThreadMXBean) ManagementFactory.getThreadMXBean();
 
     public static void main(String[] args) {
+        rounds(new FencedRows());
         FencedRows x = new FencedRows();
-        rounds(x, 3);
         long before = made();
-        rounds(x, 20);
+        rounds(x);
         long bytes = made() - before;
-        CHECKS.yes("20 rounds of all calls make almost nothing, not " + bytes + " bytes", bytes < 20000);
+        CHECKS.yes("some 500 calls of all kinds make almost nothing, not " + bytes + " bytes", bytes < 20000);
         before = made();
         FencedRows other = new FencedRows();
         bytes = made() - before;
@@ -25,8 +25,8 @@ public final class RoomTest {
         return THREADS.getThreadAllocatedBytes(Thread.currentThread().getId());
     }
 
-    private static void rounds(FencedRows x, int rounds) {
-        for (int i = 0; i < rounds; i++) {
+    private static void rounds(FencedRows x) {
+        for (int i = 0; i < 14; i++) {
             x.clearText();
             x.append('M');
             x.append('n');

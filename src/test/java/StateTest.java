@@ -1,184 +1,466 @@
-/** Promises 1, 6, 7 and 8. */
-public final class StateTest {
-    private static final Checks CHECKS = new Checks();
+import java.util.List;
 
-    public static void main(String[] args) {
-        promise1New();
-        promise6About();
-        promise6Throws();
-        promise7RowOf();
-        promise7Throws();
-        promise8BlockOf();
-        promise8Throws();
-        CHECKS.end();
+/** Promises 1 and 6 to 8. */
+public final class StateTest {
+    static final List<String> SECTIONS = List.of("Promise 1", "Promise 6", "Promise 7", "Promise 8");
+
+    private static final Checks CHECKS = new Checks();
+    private static final int LEAST = Integer.MIN_VALUE;
+    private static final int GREATEST = Integer.MAX_VALUE;
+
+    public static void main(String[] args) throws Exception {
+        Sentences s = new Sentences(CHECKS, SECTIONS);
+        s.in("Promise 1");
+        s.holds("Creates a meadow without fences; all rows are there.", StateTest::promise1New);
+        promise6(s);
+        promise7(s);
+        promise8(s);
+        s.end();
+    }
+
+    private static void promise6(Sentences s) {
+        s.in("Promise 6");
+        s.holds("Returns a number. what: 0: the blocks", StateTest::promise6Blocks);
+        s.holds("1: the rows that are away", StateTest::promise6Away);
+        s.holds("2: the book of all rows", StateTest::promise6Book);
+        s.holds("3: the field of all rows", StateTest::promise6Field);
+        s.holds("4: 1 if sums are told, otherwise 0", StateTest::promise6Told);
+        s.holds("5: the looks of all searches so far that were actions", StateTest::promise6Looks);
+        s.holds("6: the rows that were taken for away in the latest of them, how many, 0 ahead of the first one",
+                StateTest::promise6Taken);
+        s.holds("7: those of them that were not away", StateTest::promise6Wrong);
+        s.holds("8: the rows that were away and not taken for that in the latest of them, 0 ahead of the first one",
+                StateTest::promise6Missed);
+        s.holds("(7 and 8 by who was away at that search)", StateTest::promise6AtThatSearch);
+        s.holds("9: setting 0", StateTest::promise6Setting);
+        s.holds("10: the losses of all rows Returns that number.", StateTest::promise6Losses);
+        s.holds("Throws IllegalArgumentException if what is not 0 to 10", StateTest::promise6Throws);
+    }
+
+    private static void promise7(Sentences s) {
+        s.in("Promise 7");
+        s.holds("Returns a number of a row. r: row", StateTest::promise7Rows);
+        s.holds("what: 0: its weight", StateTest::promise7Weight);
+        s.holds("1: 1 if it is away, otherwise 0", StateTest::promise7Away);
+        s.holds("2: its losses", StateTest::promise7Losses);
+        s.holds("3: its block", StateTest::promise7Block);
+        s.holds("4: 1 if it was taken for away in the latest search that was an action, otherwise 0"
+                + " Returns that number.", StateTest::promise7Taken);
+        s.holds("Throws IndexOutOfBoundsException if there is no such row", StateTest::promise7NoRow);
+        s.holds("Throws IllegalArgumentException if what is not 0 to 4", StateTest::promise7NoNumber);
+    }
+
+    private static void promise8(Sentences s) {
+        s.in("Promise 8");
+        s.holds("Returns a number of a block. k: block", StateTest::promise8Blocks);
+        s.holds("what: 0: its first row", StateTest::promise8FirstRow);
+        s.holds("1: its rows, how many", StateTest::promise8Rows);
+        s.holds("2: its book", StateTest::promise8Book);
+        s.holds("3: its field", StateTest::promise8Field);
+        s.holds("4: its lie", StateTest::promise8Lie);
+        s.holds("5: the sum that it is told Returns that number.", StateTest::promise8Sum);
+        s.holds("Throws IndexOutOfBoundsException if there is no such block", StateTest::promise8NoBlock);
+        s.holds("Throws IllegalArgumentException if what is not 0 to 5", StateTest::promise8NoNumber);
+        s.holds("Throws IllegalStateException if what is 5 and no sums are told", StateTest::promise8NoSums);
     }
 
     private static void promise1New() {
         FencedRows x = new FencedRows();
-        CHECKS.is("1: NONE", FencedRows.NONE, -1);
         int[] due = {1, 0, 48, 48, 0, 0, 0, 0, 0, 1, 0};
         for (int what = 0; what < due.length; what++) {
-            CHECKS.is("1: about(" + what + ")", x.about(what), due[what]);
+            CHECKS.is("about(" + what + ")", x.about(what), due[what]);
         }
         for (int r = 0; r < 48; r++) {
-            CHECKS.is("1: weight of " + r, x.rowOf(r, 0), 1);
+            CHECKS.is("weight of " + r, x.rowOf(r, 0), 1);
             for (int what = 1; what <= 4; what++) {
-                CHECKS.is("1: rowOf(" + r + ", " + what + ")", x.rowOf(r, what), 0);
+                CHECKS.is("rowOf(" + r + ", " + what + ")", x.rowOf(r, what), 0);
             }
         }
         int[] block = {0, 48, 48, 48, 0};
         for (int what = 0; what < block.length; what++) {
-            CHECKS.is("1: blockOf(0, " + what + ")", x.blockOf(0, what), block[what]);
+            CHECKS.is("blockOf(0, " + what + ")", x.blockOf(0, what), block[what]);
         }
-        CHECKS.throwsState("1: nothing to undo", x, x::undo);
-        CHECKS.throwsState("1: slot 0 is empty", x, () -> x.restore(0));
-        CHECKS.throwsState("1: slot 1 is empty", x, () -> x.restore(1));
-        CHECKS.is("1: the text is empty", x.clearText(), 0);
+        CHECKS.throwsState("nothing to undo", FencedRows::new, FencedRows::undo);
+        CHECKS.throwsState("slot 0 is empty", FencedRows::new, y -> y.restore(0));
+        CHECKS.throwsState("slot 1 is empty", FencedRows::new, y -> y.restore(1));
+        CHECKS.answers("the text is empty", FencedRows::new, FencedRows::clearText, 0);
         FencedRows other = new FencedRows();
         other.away(0, true);
-        CHECKS.is("1: objects share nothing", x.about(1), 0);
+        CHECKS.is("objects share nothing", x.about(1), 0);
     }
 
-    /** Rows 0 to 3 weigh 1, 1, 1 and 2 in a block of their own. */
-    private static FencedRows fourRows() {
+    // ---- promise 6
+
+    private static FencedRows allAway() {
         FencedRows x = new FencedRows();
-        x.fence(4, true);
-        x.weigh(3, 2);
+        for (int r = 0; r < 48; r++) {
+            x.away(r, true);
+        }
         return x;
     }
 
-    private static void promise6About() {
-        FencedRows x = fourRows();
-        x.weigh(20, 50);
-        x.away(20, true);
-        x.away(1, true);
-        CHECKS.is("6: blocks", x.about(0), 2);
-        CHECKS.is("6: rows that are away", x.about(1), 2);
-        CHECKS.is("6: book", x.about(2), 48 + 1 + 49);
-        CHECKS.is("6: field", x.about(3), 48 + 1 - 2);
-        CHECKS.is("6: no sums told", x.about(4), 0);
+    private static void promise6Blocks() {
+        CHECKS.answers("no fence", FencedRows::new, x -> x.about(0), 1);
+        CHECKS.answers("one fence", () -> Checks.front(1), x -> x.about(0), 2);
+        CHECKS.answers("eleven fences", Checks::fullOfFences, x -> x.about(0), 12);
+    }
+
+    private static void promise6Away() {
+        CHECKS.answers("none", FencedRows::new, x -> x.about(1), 0);
+        CHECKS.answers("all", StateTest::allAway, x -> x.about(1), 48);
+        FencedRows x = allAway();
+        x.away(0, false);
+        x.away(47, false);
+        CHECKS.is("all but two", x.about(1), 46);
+    }
+
+    private static void promise6Book() {
+        CHECKS.answers("all away", StateTest::allAway, x -> x.about(2), 48);
+        FencedRows x = Checks.front(99, 2);
+        x.weigh(47, 50);
+        CHECKS.is("the ends are heavy", x.about(2), 48 + 98 + 1 + 49);
+    }
+
+    private static void promise6Field() {
+        CHECKS.answers("all away", StateTest::allAway, x -> x.about(3), 0);
+        FencedRows x = Checks.front(99, 2);
+        x.weigh(47, 50);
+        CHECKS.is("all there", x.about(3), 48 + 98 + 1 + 49);
+        x.away(0, true);
+        CHECKS.is("without the first", x.about(3), 47 + 1 + 49);
+        x.away(47, true);
+        CHECKS.is("without the last", x.about(3), 46 + 1);
+    }
+
+    private static void promise6Told() {
+        FencedRows x = new FencedRows();
+        CHECKS.is("at first", x.about(4), 0);
         x.tell();
-        CHECKS.is("6: sums told", x.about(4), 1);
-        x.away(20, false);
-        x.away(30, true);
-        int first = x.seek(0);
-        CHECKS.is("6: looks", x.about(5), first);
-        int taken = x.about(6);
-        int wrong = x.about(7);
-        int missed = x.about(8);
-        int counted = 0;
-        int wrongly = 0;
-        for (int r = 0; r < 48; r++) {
-            counted += x.rowOf(r, 4);
-            wrongly += x.rowOf(r, 4) * (1 - x.rowOf(r, 1));
-        }
-        CHECKS.is("6: taken", taken, counted);
-        CHECKS.is("6: taken wrongly", wrong, wrongly);
-        CHECKS.is("6: missed", missed, 2 - (counted - wrongly));
-        CHECKS.is("6: losses", x.about(10), counted);
-        x.away(1, false);
-        x.away(40, true);
-        x.away(41, true);
-        CHECKS.is("6: 7 by who was away then", x.about(7), wrong);
-        CHECKS.is("6: 8 by who was away then", x.about(8), missed);
-        x.ifSought(2, 0);
-        CHECKS.is("6: ifSought is no search", x.about(5), first);
-        int second = x.seek(1);
-        CHECKS.is("6: looks of two searches", x.about(5), first + second);
-        CHECKS.is("6: losses of two searches", x.about(10), counted + x.about(6));
+        CHECKS.is("told", x.about(4), 1);
+        x.weigh(0, 2);
+        x.away(1, true);
+        x.lie(0, 1);
         x.trust(0);
-        CHECKS.is("6: setting 0", x.about(9), 0);
+        x.seek(0);
+        CHECKS.is("out of date", x.about(4), 1);
+        x.fence(1, true);
+        CHECKS.is("behind a fence", x.about(4), 0);
+    }
+
+    /** Row 1 of four is away and told, by two looks. */
+    private static FencedRows searched() {
+        FencedRows x = Checks.front(1, 1, 1, 1);
+        x.away(1, true);
+        x.tell();
+        x.seek(0);
+        return x;
+    }
+
+    private static void promise6Looks() {
+        CHECKS.answers("none so far", FencedRows::new, x -> x.about(5), 0);
+        CHECKS.answers("one search", StateTest::searched, x -> x.about(5), 2);
+        FencedRows x = searched();
+        x.ifSought(0, 0);
+        x.bestWay();
+        x.runScript(1, 50000L);
+        x.simulate(7, 60);
+        CHECKS.is("what is no action does not count", x.about(5), 2);
+        x.seek(1);
+        CHECKS.is("two searches", x.about(5), 4);
+        x.undo();
+        CHECKS.is("one of them undone", x.about(5), 2);
+    }
+
+    private static void promise6Taken() {
+        CHECKS.answers("ahead of the first one", StateTest::allAway, x -> x.about(6), 0);
+        CHECKS.answers("one", StateTest::searched, x -> x.about(6), 1);
+        FencedRows x = allAway();
+        x.tell();
+        x.seek(0);
+        CHECKS.is("all", x.about(6), 48);
+        x.away(0, false);
+        x.ifSought(0, 0);
+        CHECKS.is("the latest still", x.about(6), 48);
+        x.tell();
+        x.seek(0);
+        CHECKS.is("in the latest alone", x.about(6), 47);
+    }
+
+    /** Of the first four rows one is taken wrongly by a lie; a row behind them went away since the telling. */
+    private static FencedRows mistaken() {
+        FencedRows x = Checks.front(1, 1, 1, 1);
+        x.lie(0, -1);
+        x.tell();
+        x.away(20, true);
+        x.seek(0);
+        return x;
+    }
+
+    private static void promise6Wrong() {
+        CHECKS.answers("ahead of the first one", StateTest::allAway, x -> x.about(7), 0);
+        CHECKS.answers("none", StateTest::searched, x -> x.about(7), 0);
+        CHECKS.answers("one", StateTest::mistaken, x -> x.about(7), 1);
+        FencedRows x = allAway();
+        x.tell();
+        for (int r = 0; r < 48; r++) {
+            x.away(r, false);
+        }
+        x.seek(0);
+        CHECKS.is("all", x.about(7), 48);
+    }
+
+    private static void promise6Missed() {
+        CHECKS.answers("ahead of the first one", StateTest::allAway, x -> x.about(8), 0);
+        CHECKS.answers("none", StateTest::searched, x -> x.about(8), 0);
+        CHECKS.answers("one", StateTest::mistaken, x -> x.about(8), 1);
+        FencedRows x = new FencedRows();
+        x.tell();
+        for (int r = 0; r < 48; r++) {
+            x.away(r, true);
+        }
+        x.seek(0);
+        CHECKS.is("all", x.about(8), 48);
+    }
+
+    private static void promise6AtThatSearch() {
+        FencedRows x = mistaken();
+        x.away(3, true);
+        x.away(20, false);
+        x.away(21, true);
+        x.away(22, true);
+        CHECKS.is("7 stays", x.about(7), 1);
+        CHECKS.is("8 stays", x.about(8), 1);
+        x.lie(0, 0);
+        x.tell();
+        x.seek(0);
+        CHECKS.is("7 of the next search", x.about(7), 0);
+        CHECKS.is("8 of the next search", x.about(8), 0);
+    }
+
+    private static void promise6Setting() {
+        FencedRows x = new FencedRows();
+        CHECKS.is("at first", x.about(9), 1);
+        x.trust(0);
+        CHECKS.is("set to 0", x.about(9), 0);
+        x.trust(1);
+        CHECKS.is("set to 1", x.about(9), 1);
+    }
+
+    private static void promise6Losses() {
+        CHECKS.answers("none so far", StateTest::allAway, x -> x.about(10), 0);
+        CHECKS.answers("one", StateTest::mistaken, x -> x.about(10), 1);
+        FencedRows x = allAway();
+        x.trust(0);
+        for (int i = 1; i <= 100; i++) {
+            x.seek(0);
+            CHECKS.is("of all rows, times " + i, x.about(10), 48 * Math.min(99, i));
+        }
     }
 
     private static void promise6Throws() {
-        FencedRows x = fourRows();
-        for (int wrong : new int[] {-1, 11, Integer.MIN_VALUE, Integer.MAX_VALUE}) {
-            CHECKS.throwsArgument("6: about(" + wrong + ")", x, () -> x.about(wrong));
+        for (int what = 0; what <= 10; what++) {
+            int w = what;
+            CHECKS.throwsNothing("about(" + what + ")", Checks::lived, x -> x.about(w));
+        }
+        for (int wrong : new int[] {-1, 11, LEAST, GREATEST}) {
+            CHECKS.throwsArgument("about(" + wrong + ")", Checks::lived, x -> x.about(wrong));
         }
     }
 
-    private static void promise7RowOf() {
-        FencedRows x = fourRows();
-        x.fence(47, true);
-        x.fence(1, true);
+    // ---- promise 7
+
+    private static void promise7Rows() {
+        FencedRows x = new FencedRows();
+        for (int r = 0; r < 48; r++) {
+            x.weigh(r, 99 - r);
+        }
+        for (int r = 0; r < 48; r++) {
+            CHECKS.is("row " + r, x.rowOf(r, 0), 99 - r);
+        }
+    }
+
+    private static void promise7Weight() {
+        FencedRows x = new FencedRows();
+        CHECKS.is("at first", x.rowOf(0, 0), 1);
+        x.weigh(0, 99);
+        CHECKS.is("the greatest", x.rowOf(0, 0), 99);
+        CHECKS.is("another row", x.rowOf(1, 0), 1);
+        x.away(0, true);
+        CHECKS.is("away", x.rowOf(0, 0), 99);
+    }
+
+    private static void promise7Away() {
+        FencedRows x = new FencedRows();
         x.away(0, true);
         x.away(47, true);
-        x.weigh(47, 99);
-        CHECKS.is("7: weight", x.rowOf(47, 0), 99);
-        CHECKS.is("7: away", x.rowOf(47, 1), 1);
-        CHECKS.is("7: there", x.rowOf(46, 1), 0);
+        CHECKS.is("the first", x.rowOf(0, 1), 1);
+        CHECKS.is("its neighbour", x.rowOf(1, 1), 0);
+        CHECKS.is("the last", x.rowOf(47, 1), 1);
+        CHECKS.is("its neighbour", x.rowOf(46, 1), 0);
+        x.away(47, false);
+        CHECKS.is("come back", x.rowOf(47, 1), 0);
+    }
+
+    private static void promise7Losses() {
+        FencedRows x = searched();
+        CHECKS.is("taken once", x.rowOf(1, 2), 1);
+        CHECKS.is("not taken", x.rowOf(0, 2), 0);
+        x.seek(0);
+        CHECKS.is("taken twice", x.rowOf(1, 2), 2);
+        x.away(1, false);
+        x.tell();
+        x.seek(0);
+        CHECKS.is("they stay", x.rowOf(1, 2), 2);
+    }
+
+    private static void promise7Block() {
+        CHECKS.answers("the last row without fences", FencedRows::new, x -> x.rowOf(47, 3), 0);
+        FencedRows x = new FencedRows();
+        x.fence(1, true);
+        x.fence(47, true);
+        x.fence(4, true);
         int[] rows = {0, 1, 3, 4, 46, 47};
         int[] blocks = {0, 1, 1, 2, 2, 3};
         for (int i = 0; i < rows.length; i++) {
-            CHECKS.is("7: block of " + rows[i], x.rowOf(rows[i], 3), blocks[i]);
+            CHECKS.is("row " + rows[i], x.rowOf(rows[i], 3), blocks[i]);
         }
+        CHECKS.answers("the last row with eleven fences", Checks::fullOfFences, y -> y.rowOf(47, 3), 11);
+    }
+
+    private static void promise7Taken() {
+        CHECKS.answers("ahead of the first search", StateTest::allAway, x -> x.rowOf(0, 4), 0);
+        CHECKS.answers("taken", StateTest::searched, x -> x.rowOf(1, 4), 1);
+        CHECKS.answers("not taken", StateTest::searched, x -> x.rowOf(0, 4), 0);
+        CHECKS.answers("taken wrongly", StateTest::mistaken, x -> x.rowOf(3, 4), 1);
+        CHECKS.answers("missed", StateTest::mistaken, x -> x.rowOf(20, 4), 0);
+        FencedRows x = allAway();
         x.tell();
         x.seek(0);
-        CHECKS.is("7: first row taken", x.rowOf(0, 4), 1);
-        CHECKS.is("7: last row taken", x.rowOf(47, 4), 1);
-        CHECKS.is("7: another not", x.rowOf(1, 4), 0);
+        CHECKS.is("the first row", x.rowOf(0, 4), 1);
+        CHECKS.is("the last row", x.rowOf(47, 4), 1);
         x.away(0, false);
         x.tell();
+        x.ifSought(0, 0);
+        CHECKS.is("what is no action changes none", x.rowOf(0, 4), 1);
         x.seek(0);
-        CHECKS.is("7: only the latest search", x.rowOf(0, 4), 0);
-        CHECKS.is("7: its loss stays", x.rowOf(0, 2), 1);
-        CHECKS.is("7: losses add up", x.rowOf(47, 2), 2);
+        CHECKS.is("in the latest alone", x.rowOf(0, 4), 0);
     }
 
-    private static void promise7Throws() {
-        FencedRows x = fourRows();
-        for (int wrong : new int[] {-1, 48, Integer.MIN_VALUE, Integer.MAX_VALUE}) {
-            CHECKS.throwsIndex("7: row " + wrong, x, () -> x.rowOf(wrong, 0));
-            CHECKS.throwsIndex("7: row " + wrong + ", and no such number", x, () -> x.rowOf(wrong, 5));
-        }
-        for (int wrong : new int[] {-1, 5, Integer.MIN_VALUE, Integer.MAX_VALUE}) {
-            CHECKS.throwsArgument("7: number " + wrong, x, () -> x.rowOf(47, wrong));
+    private static void promise7NoRow() {
+        for (int wrong : new int[] {-1, 48, LEAST, GREATEST}) {
+            for (int what = 0; what <= 4; what++) {
+                int w = what;
+                CHECKS.throwsIndex("rowOf(" + wrong + ", " + what + ")", Checks::lived, x -> x.rowOf(wrong, w));
+            }
+            CHECKS.throwsIndex("rowOf(" + wrong + ", 5)", Checks::lived, x -> x.rowOf(wrong, 5));
+            CHECKS.throwsIndex("rowOf(" + wrong + ", -1)", Checks::lived, x -> x.rowOf(wrong, -1));
         }
     }
 
-    private static void promise8BlockOf() {
-        FencedRows x = fourRows();
+    private static void promise7NoNumber() {
+        for (int wrong : new int[] {-1, 5, LEAST, GREATEST}) {
+            CHECKS.throwsArgument("rowOf(0, " + wrong + ")", Checks::lived, x -> x.rowOf(0, wrong));
+            CHECKS.throwsArgument("rowOf(47, " + wrong + ")", Checks::lived, x -> x.rowOf(47, wrong));
+        }
+    }
+
+    // ---- promise 8
+
+    /** Blocks of the rows 0 to 3, 4 to 45, and 46 to 47. */
+    private static FencedRows threeBlocks() {
+        FencedRows x = Checks.front(1, 1, 1, 2);
         x.fence(46, true);
         x.away(3, true);
         x.lie(0, -2);
         x.lie(2, 2);
-        int[][] due = {{0, 4, 5, 3, -2}, {4, 42, 42, 42, 0}, {46, 2, 2, 2, 2}};
-        for (int k = 0; k < 3; k++) {
-            for (int what = 0; what < 5; what++) {
-                CHECKS.is("8: blockOf(" + k + ", " + what + ")", x.blockOf(k, what), due[k][what]);
-            }
+        return x;
+    }
+
+    private static void ofBlocks(int what, int... due) {
+        FencedRows x = threeBlocks();
+        for (int k = 0; k < due.length; k++) {
+            CHECKS.is("blockOf(" + k + ", " + what + ")", x.blockOf(k, what), due[k]);
         }
+    }
+
+    private static void promise8Blocks() {
+        FencedRows x = Checks.fullOfFences();
+        for (int k = 0; k <= 11; k++) {
+            CHECKS.is("block " + k, x.blockOf(k, 0), k);
+        }
+    }
+
+    private static void promise8FirstRow() {
+        ofBlocks(0, 0, 4, 46);
+        CHECKS.answers("the only block", FencedRows::new, x -> x.blockOf(0, 0), 0);
+    }
+
+    private static void promise8Rows() {
+        ofBlocks(1, 4, 42, 2);
+        CHECKS.answers("the only block", FencedRows::new, x -> x.blockOf(0, 1), 48);
+        CHECKS.answers("one row", Checks::fullOfFences, x -> x.blockOf(10, 1), 1);
+        CHECKS.answers("the last block", Checks::fullOfFences, x -> x.blockOf(11, 1), 37);
+    }
+
+    private static void promise8Book() {
+        ofBlocks(2, 5, 42, 2);
+    }
+
+    private static void promise8Field() {
+        ofBlocks(3, 3, 42, 2);
+        CHECKS.answers("all away", StateTest::allAway, x -> x.blockOf(0, 3), 0);
+    }
+
+    private static void promise8Lie() {
+        ofBlocks(4, -2, 0, 2);
+    }
+
+    private static void promise8Sum() {
+        FencedRows x = threeBlocks();
         x.tell();
-        CHECKS.is("8: a sum and a lie below 0", x.blockOf(0, 5), 1);
-        CHECKS.is("8: a sum", x.blockOf(1, 5), 42);
-        CHECKS.is("8: a sum and a lie above 0", x.blockOf(2, 5), 4);
+        CHECKS.is("with a lie below 0", x.blockOf(0, 5), 1);
+        CHECKS.is("without a lie", x.blockOf(1, 5), 42);
+        CHECKS.is("with a lie above 0", x.blockOf(2, 5), 4);
         x.away(0, true);
         x.weigh(1, 7);
         x.lie(0, 0);
-        CHECKS.is("8: a sum stays as it was told", x.blockOf(0, 5), 1);
-        CHECKS.is("8: the field does not", x.blockOf(0, 3), 8);
+        CHECKS.is("it stays as it was told", x.blockOf(0, 5), 1);
         x.away(1, true);
         x.away(2, true);
         x.lie(0, -2);
         x.tell();
-        CHECKS.is("8: a sum below 0", x.blockOf(0, 5), -2);
-        CHECKS.is("8: the field of a block that is away", x.blockOf(0, 3), 0);
+        CHECKS.is("below 0", x.blockOf(0, 5), -2);
     }
 
-    private static void promise8Throws() {
-        FencedRows x = fourRows();
-        for (int wrong : new int[] {-1, 2, 11, 12, Integer.MIN_VALUE, Integer.MAX_VALUE}) {
-            CHECKS.throwsIndex("8: block " + wrong, x, () -> x.blockOf(wrong, 0));
-            CHECKS.throwsIndex("8: block " + wrong + ", and no such number", x, () -> x.blockOf(wrong, 6));
-            CHECKS.throwsIndex("8: block " + wrong + ", and no sums", x, () -> x.blockOf(wrong, 5));
+    private static void promise8NoBlock() {
+        for (int wrong : new int[] {-1, 3, 11, 12, LEAST, GREATEST}) {
+            for (int what = 0; what <= 5; what++) {
+                int w = what;
+                CHECKS.throwsIndex("blockOf(" + wrong + ", " + what + ")", StateTest::threeBlocks,
+                        x -> x.blockOf(wrong, w));
+            }
+            CHECKS.throwsIndex("blockOf(" + wrong + ", 6)", StateTest::threeBlocks, x -> x.blockOf(wrong, 6));
         }
-        for (int wrong : new int[] {-1, 6, Integer.MIN_VALUE, Integer.MAX_VALUE}) {
-            CHECKS.throwsArgument("8: number " + wrong, x, () -> x.blockOf(1, wrong));
+        CHECKS.throwsIndex("block 1 of one", FencedRows::new, x -> x.blockOf(1, 0));
+        CHECKS.throwsIndex("block 12 of twelve", Checks::fullOfFences, x -> x.blockOf(12, 0));
+    }
+
+    private static void promise8NoNumber() {
+        for (int wrong : new int[] {-1, 6, LEAST, GREATEST}) {
+            CHECKS.throwsArgument("blockOf(2, " + wrong + ")", StateTest::threeBlocks, x -> x.blockOf(2, wrong));
         }
-        CHECKS.throwsState("8: no sums are told", x, () -> x.blockOf(1, 5));
+    }
+
+    private static void promise8NoSums() {
+        CHECKS.throwsState("none yet", StateTest::threeBlocks, x -> x.blockOf(1, 5));
+        FencedRows x = threeBlocks();
         x.tell();
-        CHECKS.is("8: sums are told", x.blockOf(1, 5), 44);
+        CHECKS.is("told", x.blockOf(1, 5), 42);
         x.fence(5, true);
-        CHECKS.throwsState("8: no sums any more", x, () -> x.blockOf(1, 5));
+        CHECKS.same("none any more", Checks.thrown(x, y -> y.blockOf(1, 5)), IllegalStateException.class.getName());
+        for (int what = 0; what <= 4; what++) {
+            int w = what;
+            CHECKS.throwsNothing("blockOf(1, " + what + ")", StateTest::threeBlocks, y -> y.blockOf(1, w));
+        }
     }
 }
