@@ -481,9 +481,11 @@ public final class ActionsTest {
         CHECKS.is("setting 0", x.about(9), 0);
         CHECKS.is("sums are told still", x.about(4), 1);
         CHECKS.is("a look at each block", x.seek(1), 2 + 1);
+        x.lie(0, -1);
         x.trust(1);
         CHECKS.is("setting 0 again", x.about(9), 1);
         CHECKS.is("none at the blocks", x.seek(1), 1);
+        CHECKS.is("lies stay", x.blockOf(0, 4), -1);
     }
 
     private static void promise16Values() {

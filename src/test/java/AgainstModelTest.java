@@ -99,15 +99,15 @@ public final class AgainstModelTest {
         for (int what = 0; what <= 10; what++) {
             due.add(model.about(what));
         }
-        for (int r = 0; r < 48; r++) {
-            for (int what : new int[] {0, 1, 2, 4}) {
-                due.add(model.rowOf(r, what));
-            }
-        }
         for (int k = 0; k < model.about(0); k++) {
             due.add(model.blockOf(k, 0));
             due.add(model.blockOf(k, 4));
             due.add(model.about(4) == 1 ? model.blockOf(k, 5) : 0);
+        }
+        for (int r = 0; r < 48; r++) {
+            for (int what : new int[] {0, 1, 2, 4}) {
+                due.add(model.rowOf(r, what));
+            }
         }
         List<Integer> got = Checks.seen(x);
         if (!got.equals(due)) {

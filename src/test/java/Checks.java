@@ -97,15 +97,15 @@ final class Checks {
     /** The state, by some 240 calls that change nothing. */
     static List<Integer> seen(FencedRows x) {
         List<Integer> seen = glance(x);
-        for (int r = 0; r < 48; r++) {
-            for (int what : new int[] {0, 1, 2, 4}) {
-                seen.add(x.rowOf(r, what));
-            }
-        }
         for (int k = 0; k < seen.get(0); k++) {
             seen.add(x.blockOf(k, 0));
             seen.add(x.blockOf(k, 4));
             seen.add(seen.get(4) == 1 ? x.blockOf(k, 5) : 0);
+        }
+        for (int r = 0; r < 48; r++) {
+            for (int what : new int[] {0, 1, 2, 4}) {
+                seen.add(x.rowOf(r, what));
+            }
         }
         return seen;
     }
@@ -174,16 +174,17 @@ final class Checks {
         return x;
     }
 
-    /** A meadow in which nothing is as in a new object. */
+    /** A meadow in which nothing is as in a new object: row 3 was taken wrongly, and row 35 was missed. */
     static FencedRows lived() {
         FencedRows x = typed("Mw0507a06s02n");
         x.fence(4, true);
         x.fence(30, true);
-        x.weigh(3, 2);
+        x.weigh(2, 2);
         x.away(1, true);
         x.lie(0, -1);
         x.tell();
         x.save(0);
+        x.away(35, true);
         x.seek(2);
         x.away(2, true);
         x.lie(2, 1);

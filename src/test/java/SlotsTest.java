@@ -33,6 +33,7 @@ public final class SlotsTest {
         x.spread(4);
         x.weigh(47, 99);
         x.away(10, true);
+        x.lie(0, -2);
         x.lie(4, 2);
         x.tell();
         x.seek(1);
@@ -59,7 +60,8 @@ public final class SlotsTest {
         FencedRows y = other();
         y.save(0);
         CHECKS.same("the present state stays", Checks.seen(y), Checks.seen(other()));
-        CHECKS.is("it is no action", y.undo(), 5);
+        CHECKS.is("also a lie", y.blockOf(0, 4), -2);
+        CHECKS.is("it is no action", y.undo(), 6);
     }
 
     private static void promise27Slots() {

@@ -222,12 +222,13 @@ public final class UndoTest {
     }
 
     private static void faceText() {
-        FencedRows x = some();
-        x.append('M');
+        FencedRows x = Checks.lived();
+        x.append('x');
         x.errorPosition();
         x.clearText();
-        CHECKS.same("the state", Checks.seen(x), Checks.seen(some()));
-        CHECKS.is("no action", x.undo(), 3);
+        CHECKS.same("the state", Checks.seen(x), Checks.seen(Checks.lived()));
+        CHECKS.is("no action", x.undo(), 11);
+        CHECKS.is("slot 0", x.restore(0) + x.about(9), 3 + 1);
         CHECKS.throwsNothing("load", () -> Checks.typed("M"), FencedRows::load);
     }
 
@@ -244,6 +245,14 @@ public final class UndoTest {
             int w = what;
             CHECKS.keeps("blockOf(1, " + what + ")", Checks::lived, x -> x.blockOf(1, w));
         }
+        CHECKS.answers("the text behind about", Checks::lived, x -> x.about(0) * 0 + x.clearText(), 13);
+        CHECKS.answers("the text behind rowOf", Checks::lived, x -> x.rowOf(0, 0) * 0 + x.clearText(), 13);
+        CHECKS.answers("the text behind blockOf", Checks::lived, x -> x.blockOf(0, 0) * 0 + x.clearText(), 13);
+        FencedRows x = Checks.lived();
+        CHECKS.is("row 3 was taken wrongly", x.about(7), 1);
+        CHECKS.is("row 35 was missed", x.about(8), 1);
+        CHECKS.is("block 0 lies", x.blockOf(0, 4), -1);
+        CHECKS.is("its sum is out of date", x.blockOf(0, 5) - x.blockOf(0, 3), 1);
     }
 
     private static void faceChangeNothing() {

@@ -691,6 +691,6 @@ public final class WouldBeTest {
         x.away(20, true);
         x.fence(10, false);
         CHECKS.is("none any more", x.farthest(), NONE);
-        CHECKS.answers("untrusted, one heavier by 59", Checks::lived, FencedRows::farthest, 2);
+        CHECKS.answers("untrusted", Checks::lived, FencedRows::farthest, 2);
     }
 }
