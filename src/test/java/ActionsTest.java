@@ -82,13 +82,13 @@ public final class ActionsTest {
     // ---- promises 9 and 10
 
     private static void promise9Changes() {
-        FencedRows x = Checks.lived();
+        FencedRows x = Meadows.lived();
         x.weigh(0, 44);
         x.weigh(47, 55);
         CHECKS.is("the first row", x.rowOf(0, 0), 44);
         CHECKS.is("the last row", x.rowOf(47, 0), 55);
-        CHECKS.is("the others", x.about(2), Checks.lived().about(2) + 43 + 54);
-        FencedRows told = Checks.front(1, 1);
+        CHECKS.is("the others", x.about(2), Meadows.lived().about(2) + 43 + 54);
+        FencedRows told = Meadows.front(1, 1);
         told.tell();
         told.weigh(0, 9);
         CHECKS.is("a told sum stays", told.blockOf(0, 5), 2);
@@ -113,16 +113,16 @@ public final class ActionsTest {
 
     private static void promise9NoRow() {
         for (int r : NO_ROWS) {
-            CHECKS.throwsIndex("row " + r, Checks::lived, x -> x.weigh(r, 1));
-            CHECKS.throwsIndex("row " + r + ", and weight 0", Checks::lived, x -> x.weigh(r, 0));
-            CHECKS.throwsIndex("row " + r + ", and weight 100", Checks::lived, x -> x.weigh(r, 100));
+            CHECKS.throwsIndex("row " + r, Meadows::lived, x -> x.weigh(r, 1));
+            CHECKS.throwsIndex("row " + r + ", and weight 0", Meadows::lived, x -> x.weigh(r, 0));
+            CHECKS.throwsIndex("row " + r + ", and weight 100", Meadows::lived, x -> x.weigh(r, 100));
         }
     }
 
     private static void promise9NoWeight() {
         for (int w : new int[] {0, 100, -1, LEAST, GREATEST}) {
-            CHECKS.throwsArgument("weight " + w, Checks::lived, x -> x.weigh(0, w));
-            CHECKS.throwsArgument("weight " + w + " of the last row", Checks::lived, x -> x.weigh(47, w));
+            CHECKS.throwsArgument("weight " + w, Meadows::lived, x -> x.weigh(0, w));
+            CHECKS.throwsArgument("weight " + w + " of the last row", Meadows::lived, x -> x.weigh(47, w));
         }
     }
 
@@ -158,8 +158,8 @@ public final class ActionsTest {
 
     private static void promise10NoRow() {
         for (int r : NO_ROWS) {
-            CHECKS.throwsIndex("row " + r, Checks::lived, x -> x.away(r, true));
-            CHECKS.throwsIndex("row " + r + " back", Checks::lived, x -> x.away(r, false));
+            CHECKS.throwsIndex("row " + r, Meadows::lived, x -> x.away(r, true));
+            CHECKS.throwsIndex("row " + r + " back", Meadows::lived, x -> x.away(r, false));
         }
     }
 
@@ -187,7 +187,7 @@ public final class ActionsTest {
     }
 
     private static void promise11Then() {
-        FencedRows x = Checks.front(1, 1);
+        FencedRows x = Meadows.front(1, 1);
         x.fence(2, true);
         CHECKS.is("put where one stands", x.about(0), 2);
         x.fence(3, false);
@@ -211,23 +211,23 @@ public final class ActionsTest {
 
     private static void promise11NoPlace() {
         for (int r : new int[] {0, 48, -1, LEAST, GREATEST}) {
-            CHECKS.throwsIndex("put at " + r, Checks::lived, x -> x.fence(r, true));
-            CHECKS.throwsIndex("taken at " + r, Checks::lived, x -> x.fence(r, false));
-            CHECKS.throwsIndex("put at " + r + ", and there are 11", Checks::fullOfFences, x -> x.fence(r, true));
+            CHECKS.throwsIndex("put at " + r, Meadows::lived, x -> x.fence(r, true));
+            CHECKS.throwsIndex("taken at " + r, Meadows::lived, x -> x.fence(r, false));
+            CHECKS.throwsIndex("put at " + r + ", and there are 11", Meadows::fullOfFences, x -> x.fence(r, true));
         }
     }
 
     private static void promise11Full() {
         for (int r : new int[] {12, 13, 30, 47}) {
-            CHECKS.throwsState("the twelfth at " + r, Checks::fullOfFences, x -> x.fence(r, true));
-            CHECKS.answers("none at " + r + " to take", Checks::fullOfFences, x -> x.fence(r, false), 12);
+            CHECKS.throwsState("the twelfth at " + r, Meadows::fullOfFences, x -> x.fence(r, true));
+            CHECKS.answers("none at " + r + " to take", Meadows::fullOfFences, x -> x.fence(r, false), 12);
         }
         for (int r = 1; r <= 11; r++) {
             int at = r;
-            CHECKS.answers("put again at " + r, Checks::fullOfFences, x -> x.fence(at, true), 12);
-            CHECKS.answers("taken at " + r, Checks::fullOfFences, x -> x.fence(at, false), 11);
+            CHECKS.answers("put again at " + r, Meadows::fullOfFences, x -> x.fence(at, true), 12);
+            CHECKS.answers("taken at " + r, Meadows::fullOfFences, x -> x.fence(at, false), 11);
         }
-        FencedRows x = Checks.fullOfFences();
+        FencedRows x = Meadows.fullOfFences();
         x.fence(5, false);
         CHECKS.is("the eleventh again", x.fence(30, true), 12);
         FencedRows spread = new FencedRows();
@@ -243,7 +243,7 @@ public final class ActionsTest {
         x.spread(1);
         CHECKS.is("just one fence", x.about(0), 2);
         CHECKS.is("it stands in the middle", x.blockOf(1, 0), 24);
-        FencedRows full = Checks.fullOfFences();
+        FencedRows full = Meadows.fullOfFences();
         full.spread(11);
         for (int k = 0; k < 12; k++) {
             CHECKS.is("others of eleven, block " + k, full.blockOf(k, 0), 4 * k);
@@ -319,14 +319,14 @@ public final class ActionsTest {
 
     private static void promise12Throws() {
         for (int n : new int[] {0, 12, -1, LEAST, GREATEST}) {
-            CHECKS.throwsArgument("spread(" + n + ")", Checks::lived, x -> x.spread(n));
+            CHECKS.throwsArgument("spread(" + n + ")", Meadows::lived, x -> x.spread(n));
         }
     }
 
     // ---- promises 13 and 14
 
     private static void promise13Changes() {
-        FencedRows x = Checks.front(1, 1);
+        FencedRows x = Meadows.front(1, 1);
         x.tell();
         x.lie(1, 2);
         CHECKS.is("the lie", x.blockOf(1, 4), 2);
@@ -343,7 +343,7 @@ public final class ActionsTest {
         CHECKS.answers("the only one", FencedRows::new, x -> x.lie(0, 1) + 10 * x.blockOf(0, 4), 10);
         for (int k = 0; k <= 11; k++) {
             int block = k;
-            CHECKS.answers("block " + k, Checks::fullOfFences, x -> x.lie(block, 2) + 10 * x.blockOf(block, 4), 20);
+            CHECKS.answers("block " + k, Meadows::fullOfFences, x -> x.lie(block, 2) + 10 * x.blockOf(block, 4), 20);
         }
     }
 
@@ -356,7 +356,7 @@ public final class ActionsTest {
     }
 
     private static void promise13Previous() {
-        FencedRows x = Checks.front(1);
+        FencedRows x = Meadows.front(1);
         CHECKS.is("the first", x.lie(0, -2), 0);
         CHECKS.is("the second", x.lie(0, 2), -2);
         CHECKS.is("the third", x.lie(0, 2), 2);
@@ -367,23 +367,23 @@ public final class ActionsTest {
 
     private static void promise13NoBlock() {
         for (int k : new int[] {-1, 3, 11, 12, LEAST, GREATEST}) {
-            CHECKS.throwsIndex("block " + k, Checks::lived, x -> x.lie(k, 0));
-            CHECKS.throwsIndex("block " + k + ", and lie 3", Checks::lived, x -> x.lie(k, 3));
-            CHECKS.throwsIndex("block " + k + ", and lie -3", Checks::lived, x -> x.lie(k, -3));
+            CHECKS.throwsIndex("block " + k, Meadows::lived, x -> x.lie(k, 0));
+            CHECKS.throwsIndex("block " + k + ", and lie 3", Meadows::lived, x -> x.lie(k, 3));
+            CHECKS.throwsIndex("block " + k + ", and lie -3", Meadows::lived, x -> x.lie(k, -3));
         }
         CHECKS.throwsIndex("block 1 of one", FencedRows::new, x -> x.lie(1, 0));
-        CHECKS.throwsIndex("block 12 of twelve", Checks::fullOfFences, x -> x.lie(12, 0));
+        CHECKS.throwsIndex("block 12 of twelve", Meadows::fullOfFences, x -> x.lie(12, 0));
     }
 
     private static void promise13NoLie() {
         for (int v : new int[] {-3, 3, LEAST, GREATEST}) {
-            CHECKS.throwsArgument("lie " + v, Checks::lived, x -> x.lie(0, v));
-            CHECKS.throwsArgument("lie " + v + " of the last block", Checks::lived, x -> x.lie(2, v));
+            CHECKS.throwsArgument("lie " + v, Meadows::lived, x -> x.lie(0, v));
+            CHECKS.throwsArgument("lie " + v + " of the last block", Meadows::lived, x -> x.lie(2, v));
         }
     }
 
     private static void promise14Tells() {
-        FencedRows x = Checks.fullOfFences();
+        FencedRows x = Meadows.fullOfFences();
         x.away(3, true);
         x.away(47, true);
         x.lie(5, 2);
@@ -399,7 +399,7 @@ public final class ActionsTest {
 
     private static void promise14Together() {
         CHECKS.answers("one block", FencedRows::new, FencedRows::tell, 48);
-        FencedRows x = Checks.front(1, 1);
+        FencedRows x = Meadows.front(1, 1);
         x.weigh(5, 20);
         x.away(4, true);
         CHECKS.is("two blocks", x.tell(), 48 + 19 - 1);
@@ -422,22 +422,14 @@ public final class ActionsTest {
 
     // ---- promises 15 and 16
 
-    /** Four rows that weigh 1, 1, 1 and 9, of which the last is away and told. */
-    private static FencedRows uneven() {
-        FencedRows x = Checks.front(1, 1, 1, 9);
-        x.away(3, true);
-        x.tell();
-        return x;
-    }
-
     private static void promise15Searches() {
         int[] due = {2, 1, 2};
         for (int way = 0; way <= 2; way++) {
             int w = way;
-            CHECKS.answers("way " + way, ActionsTest::uneven, x -> x.seek(w), due[way]);
-            CHECKS.answers("way " + way + " takes the row", ActionsTest::uneven, x -> x.seek(w) * 0 + x.rowOf(3, 4), 1);
+            CHECKS.answers("way " + way, Meadows::uneven, x -> x.seek(w), due[way]);
+            CHECKS.answers("way " + way + " takes the row", Meadows::uneven, x -> x.seek(w) * 0 + x.rowOf(3, 4), 1);
         }
-        FencedRows losses = uneven();
+        FencedRows losses = Meadows.uneven();
         losses.seek(0);
         CHECKS.is("way 2, losses of 1", losses.seek(2), 2);
         CHECKS.is("way 2, losses of 2", losses.seek(2), 1);
@@ -449,7 +441,7 @@ public final class ActionsTest {
             x.tell();
             return x;
         }, x -> x.seek(0), 0);
-        FencedRows x = uneven();
+        FencedRows x = Meadows.uneven();
         CHECKS.is("of the first search", x.seek(0), 2);
         CHECKS.is("of the second search alone", x.seek(1), 1);
         CHECKS.is("both together", x.about(5), 3);
@@ -457,8 +449,8 @@ public final class ActionsTest {
 
     private static void promise15NoWay() {
         for (int way : new int[] {-1, 3, LEAST, GREATEST}) {
-            CHECKS.throwsArgument("way " + way, ActionsTest::uneven, x -> x.seek(way));
-            CHECKS.throwsArgument("way " + way + ", untrusted", Checks::lived, x -> x.seek(way));
+            CHECKS.throwsArgument("way " + way, Meadows::uneven, x -> x.seek(way));
+            CHECKS.throwsArgument("way " + way + ", untrusted", Meadows::lived, x -> x.seek(way));
             CHECKS.throwsArgument("way " + way + ", and no sums", FencedRows::new, x -> x.seek(way));
         }
     }
@@ -466,17 +458,17 @@ public final class ActionsTest {
     private static void promise15NoSums() {
         for (int way = 0; way <= 2; way++) {
             int w = way;
-            CHECKS.throwsState("way " + way, () -> Checks.front(1, 1), x -> x.seek(w));
-            CHECKS.answers("setting 0 is 0, way " + way, () -> Checks.front(1, 1), x -> x.trust(0) * 0 + x.seek(w), 2);
+            CHECKS.throwsState("way " + way, () -> Meadows.front(1, 1), x -> x.seek(w));
+            CHECKS.answers("setting 0 is 0, way " + way, () -> Meadows.front(1, 1), x -> x.trust(0) * 0 + x.seek(w), 2);
         }
-        FencedRows x = uneven();
+        FencedRows x = Meadows.uneven();
         CHECKS.is("sums are told", x.seek(0), 2);
         x.fence(4, false);
         CHECKS.same("no sums any more", Checks.thrown(x, y -> y.seek(0)), IllegalStateException.class.getName());
     }
 
     private static void promise16Changes() {
-        FencedRows x = uneven();
+        FencedRows x = Meadows.uneven();
         x.trust(0);
         CHECKS.is("setting 0", x.about(9), 0);
         CHECKS.is("sums are told still", x.about(4), 1);
@@ -506,7 +498,7 @@ public final class ActionsTest {
 
     private static void promise16Throws() {
         for (int v : new int[] {-1, 2, LEAST, GREATEST}) {
-            CHECKS.throwsArgument("trust(" + v + ")", Checks::lived, x -> x.trust(v));
+            CHECKS.throwsArgument("trust(" + v + ")", Meadows::lived, x -> x.trust(v));
             CHECKS.throwsArgument("trust(" + v + ") of a new object", FencedRows::new, x -> x.trust(v));
         }
     }

@@ -277,7 +277,8 @@ public final class AgainstModelTest {
         }
         if (random.nextInt(3) == 0) {
             int place = random.nextInt(made.length());
-            made.setCharAt(place, random.nextBoolean() ? (char) ('0' + random.nextInt(10)) : (char) random.nextInt(256));
+            int sign = random.nextBoolean() ? '0' + random.nextInt(10) : random.nextInt(256);
+            made.setCharAt(place, (char) sign);
         }
         for (int i = 0; i < made.length() && !differs; i++) {
             int c = made.charAt(i);

@@ -25,7 +25,7 @@ public final class DocumentTest {
         CHECKS.same("the sections that are tested", new TreeSet<>(tested), new TreeSet<>(Sentences.names()));
     }
 
-    /** An object is used for at most 512 calls: the last of them answers like the first, after the dearest there are. */
+    /** An object is used for at most 512 calls: the last of them answers like the first, behind the dearest. */
     private static void callsUpTo512(int way) {
         FencedRows x = new FencedRows();
         int calls = 0;

@@ -26,74 +26,74 @@ public final class ExceptionsTest {
 
     private static void noSuchRow() {
         for (int r : new int[] {-1, 48, LEAST, GREATEST}) {
-            CHECKS.throwsIndex("rowOf, row " + r, Checks::lived, x -> x.rowOf(r, 0));
-            CHECKS.throwsIndex("weigh, row " + r, Checks::lived, x -> x.weigh(r, 1));
-            CHECKS.throwsIndex("away, row " + r, Checks::lived, x -> x.away(r, false));
+            CHECKS.throwsIndex("rowOf, row " + r, Meadows::lived, x -> x.rowOf(r, 0));
+            CHECKS.throwsIndex("weigh, row " + r, Meadows::lived, x -> x.weigh(r, 1));
+            CHECKS.throwsIndex("away, row " + r, Meadows::lived, x -> x.away(r, false));
         }
     }
 
     /** There are the blocks 0 to 2; block 3 is none, though there could be one. */
     private static void noSuchBlock() {
         for (int k : new int[] {-1, 3, 11, 12, LEAST, GREATEST}) {
-            CHECKS.throwsIndex("blockOf, block " + k, Checks::lived, x -> x.blockOf(k, 5));
-            CHECKS.throwsIndex("lie, block " + k, Checks::lived, x -> x.lie(k, 0));
-            CHECKS.throwsIndex("looks, block " + k, Checks::lived, x -> x.looks(k, 0, 0));
-            CHECKS.throwsIndex("leastLooks, block " + k, Checks::lived, x -> x.leastLooks(k));
-            CHECKS.throwsIndex("canBe, block " + k, Checks::lived, x -> x.canBe(k));
+            CHECKS.throwsIndex("blockOf, block " + k, Meadows::lived, x -> x.blockOf(k, 5));
+            CHECKS.throwsIndex("lie, block " + k, Meadows::lived, x -> x.lie(k, 0));
+            CHECKS.throwsIndex("looks, block " + k, Meadows::lived, x -> x.looks(k, 0, 0));
+            CHECKS.throwsIndex("leastLooks, block " + k, Meadows::lived, x -> x.leastLooks(k));
+            CHECKS.throwsIndex("canBe, block " + k, Meadows::lived, x -> x.canBe(k));
         }
         for (int k = 0; k <= 2; k++) {
             int block = k;
-            CHECKS.throwsNothing("blockOf, block " + k, Checks::lived, x -> x.blockOf(block, 5));
-            CHECKS.throwsNothing("lie, block " + k, Checks::lived, x -> x.lie(block, 0));
-            CHECKS.throwsNothing("looks, block " + k, Checks::lived, x -> x.looks(block, 0, 0));
-            CHECKS.throwsNothing("leastLooks, block " + k, Checks::lived, x -> x.leastLooks(block));
-            CHECKS.throwsNothing("canBe, block " + k, Checks::lived, x -> x.canBe(block));
+            CHECKS.throwsNothing("blockOf, block " + k, Meadows::lived, x -> x.blockOf(block, 5));
+            CHECKS.throwsNothing("lie, block " + k, Meadows::lived, x -> x.lie(block, 0));
+            CHECKS.throwsNothing("looks, block " + k, Meadows::lived, x -> x.looks(block, 0, 0));
+            CHECKS.throwsNothing("leastLooks, block " + k, Meadows::lived, x -> x.leastLooks(block));
+            CHECKS.throwsNothing("canBe, block " + k, Meadows::lived, x -> x.canBe(block));
         }
     }
 
     private static void noSuchPlace() {
         for (int r : new int[] {0, 48, -1, LEAST, GREATEST}) {
-            CHECKS.throwsIndex("put at " + r, Checks::lived, x -> x.fence(r, true));
-            CHECKS.throwsIndex("taken at " + r, Checks::lived, x -> x.fence(r, false));
+            CHECKS.throwsIndex("put at " + r, Meadows::lived, x -> x.fence(r, true));
+            CHECKS.throwsIndex("taken at " + r, Meadows::lived, x -> x.fence(r, false));
         }
     }
 
     private static void noSuchSlot() {
         for (int slot : new int[] {-1, 2, LEAST, GREATEST}) {
-            CHECKS.throwsIndex("save, slot " + slot, Checks::lived, x -> x.save(slot));
-            CHECKS.throwsIndex("restore, slot " + slot, Checks::lived, x -> x.restore(slot));
+            CHECKS.throwsIndex("save, slot " + slot, Meadows::lived, x -> x.save(slot));
+            CHECKS.throwsIndex("restore, slot " + slot, Meadows::lived, x -> x.restore(slot));
         }
     }
 
     private static void outOfRange() {
-        CHECKS.throwsArgument("append", Checks::lived, x -> x.append(256));
-        CHECKS.throwsArgument("about", Checks::lived, x -> x.about(11));
-        CHECKS.throwsArgument("rowOf", Checks::lived, x -> x.rowOf(0, 5));
-        CHECKS.throwsArgument("blockOf", Checks::lived, x -> x.blockOf(0, 6));
-        CHECKS.throwsArgument("weigh", Checks::lived, x -> x.weigh(0, 100));
-        CHECKS.throwsArgument("spread", Checks::lived, x -> x.spread(12));
-        CHECKS.throwsArgument("lie", Checks::lived, x -> x.lie(0, 3));
-        CHECKS.throwsArgument("seek", Checks::lived, x -> x.seek(3));
-        CHECKS.throwsArgument("trust", Checks::lived, x -> x.trust(2));
-        CHECKS.throwsArgument("ifSought, its way", Checks::lived, x -> x.ifSought(3, 0));
-        CHECKS.throwsArgument("ifSought, its number", Checks::lived, x -> x.ifSought(0, 4));
-        CHECKS.throwsArgument("looks, its way", Checks::lived, x -> x.looks(0, 3, 0));
-        CHECKS.throwsArgument("looks, its number", Checks::lived, x -> x.looks(0, 0, 2));
-        CHECKS.throwsArgument("balanced", Checks::lived, x -> x.balanced(12));
-        CHECKS.throwsArgument("runScript, its number", Checks::lived, x -> x.runScript(4, 0L));
-        CHECKS.throwsArgument("runScript, its script", Checks::lived, x -> x.runScript(1, 100000L));
-        CHECKS.throwsArgument("simulate", Checks::lived, x -> x.simulate(0L, 61));
+        CHECKS.throwsArgument("append", Meadows::lived, x -> x.append(256));
+        CHECKS.throwsArgument("about", Meadows::lived, x -> x.about(11));
+        CHECKS.throwsArgument("rowOf", Meadows::lived, x -> x.rowOf(0, 5));
+        CHECKS.throwsArgument("blockOf", Meadows::lived, x -> x.blockOf(0, 6));
+        CHECKS.throwsArgument("weigh", Meadows::lived, x -> x.weigh(0, 100));
+        CHECKS.throwsArgument("spread", Meadows::lived, x -> x.spread(12));
+        CHECKS.throwsArgument("lie", Meadows::lived, x -> x.lie(0, 3));
+        CHECKS.throwsArgument("seek", Meadows::lived, x -> x.seek(3));
+        CHECKS.throwsArgument("trust", Meadows::lived, x -> x.trust(2));
+        CHECKS.throwsArgument("ifSought, its way", Meadows::lived, x -> x.ifSought(3, 0));
+        CHECKS.throwsArgument("ifSought, its number", Meadows::lived, x -> x.ifSought(0, 4));
+        CHECKS.throwsArgument("looks, its way", Meadows::lived, x -> x.looks(0, 3, 0));
+        CHECKS.throwsArgument("looks, its number", Meadows::lived, x -> x.looks(0, 0, 2));
+        CHECKS.throwsArgument("balanced", Meadows::lived, x -> x.balanced(12));
+        CHECKS.throwsArgument("runScript, its number", Meadows::lived, x -> x.runScript(4, 0L));
+        CHECKS.throwsArgument("runScript, its script", Meadows::lived, x -> x.runScript(1, 100000L));
+        CHECKS.throwsArgument("simulate", Meadows::lived, x -> x.simulate(0L, 61));
     }
 
     private static FencedRows fullText() {
-        return Checks.typed("M" + "n".repeat(119));
+        return Meadows.typed("M" + "n".repeat(119));
     }
 
     private static void whatTheMethodSays() {
         CHECKS.throwsState("append to a full text", ExceptionsTest::fullText, x -> x.append('n'));
-        CHECKS.throwsState("load of no meadow", () -> Checks.typed("m"), FencedRows::load);
+        CHECKS.throwsState("load of no meadow", () -> Meadows.typed("m"), FencedRows::load);
         CHECKS.throwsState("the sum of a block, none told", FencedRows::new, x -> x.blockOf(0, 5));
-        CHECKS.throwsState("the twelfth fence", Checks::fullOfFences, x -> x.fence(40, true));
+        CHECKS.throwsState("the twelfth fence", Meadows::fullOfFences, x -> x.fence(40, true));
         CHECKS.throwsState("a search, no sums told", FencedRows::new, x -> x.seek(0));
         CHECKS.throwsState("what a search would bring, no sums told", FencedRows::new, x -> x.ifSought(0, 0));
         CHECKS.throwsState("undo, no state remembered", FencedRows::new, FencedRows::undo);
@@ -103,28 +103,28 @@ public final class ExceptionsTest {
 
     private static void firstNamed() {
         CHECKS.throwsArgument("append: no code, a full text", ExceptionsTest::fullText, x -> x.append(-1));
-        CHECKS.throwsIndex("rowOf: no row, no number", Checks::lived, x -> x.rowOf(48, 5));
-        CHECKS.throwsIndex("blockOf: no block, no number", Checks::lived, x -> x.blockOf(3, 6));
+        CHECKS.throwsIndex("rowOf: no row, no number", Meadows::lived, x -> x.rowOf(48, 5));
+        CHECKS.throwsIndex("blockOf: no block, no number", Meadows::lived, x -> x.blockOf(3, 6));
         CHECKS.throwsIndex("blockOf: no block, no sums", FencedRows::new, x -> x.blockOf(1, 5));
         CHECKS.throwsArgument("blockOf: no number, no sums", FencedRows::new, x -> x.blockOf(0, 6));
-        CHECKS.throwsIndex("weigh: no row, no weight", Checks::lived, x -> x.weigh(48, 0));
-        CHECKS.throwsIndex("fence: no place, eleven fences", Checks::fullOfFences, x -> x.fence(48, true));
-        CHECKS.throwsIndex("lie: no block, no lie", Checks::lived, x -> x.lie(3, 3));
+        CHECKS.throwsIndex("weigh: no row, no weight", Meadows::lived, x -> x.weigh(48, 0));
+        CHECKS.throwsIndex("fence: no place, eleven fences", Meadows::fullOfFences, x -> x.fence(48, true));
+        CHECKS.throwsIndex("lie: no block, no lie", Meadows::lived, x -> x.lie(3, 3));
         CHECKS.throwsArgument("seek: no way, no sums", FencedRows::new, x -> x.seek(3));
         CHECKS.throwsArgument("ifSought: no way, no sums", FencedRows::new, x -> x.ifSought(3, 0));
         CHECKS.throwsArgument("ifSought: no number, no sums", FencedRows::new, x -> x.ifSought(0, 4));
-        CHECKS.throwsArgument("ifSought: no way, no number", Checks::lived, x -> x.ifSought(-1, -1));
-        CHECKS.throwsIndex("looks: no block, no way", Checks::lived, x -> x.looks(3, 3, 0));
-        CHECKS.throwsIndex("looks: no block, no number", Checks::lived, x -> x.looks(3, 0, 2));
+        CHECKS.throwsArgument("ifSought: no way, no number", Meadows::lived, x -> x.ifSought(-1, -1));
+        CHECKS.throwsIndex("looks: no block, no way", Meadows::lived, x -> x.looks(3, 3, 0));
+        CHECKS.throwsIndex("looks: no block, no number", Meadows::lived, x -> x.looks(3, 0, 2));
         CHECKS.throwsIndex("canBe: no block, no sums", FencedRows::new, x -> x.canBe(1));
-        CHECKS.throwsArgument("runScript: no number, no script", Checks::lived, x -> x.runScript(0, -1L));
+        CHECKS.throwsArgument("runScript: no number, no script", Meadows::lived, x -> x.runScript(0, -1L));
         CHECKS.throwsIndex("restore: no slot, nothing saved", FencedRows::new, x -> x.restore(2));
     }
 
     /** One call of each method behind those that throw, whose answer would show what they had changed. */
     private static void changesNothing() {
-        FencedRows x = Checks.lived();
-        FencedRows same = Checks.lived();
+        FencedRows x = Meadows.lived();
+        FencedRows same = Meadows.lived();
         Checks.Use[] throwing = {y -> y.append(256), y -> y.about(11), y -> y.rowOf(48, 0), y -> y.blockOf(3, 0),
             y -> y.weigh(0, 100), y -> y.away(48, true), y -> y.fence(0, true), y -> y.spread(0), y -> y.lie(0, 3),
             y -> y.seek(3), y -> y.trust(2), y -> y.ifSought(0, 4), y -> y.looks(0, 0, 2), y -> y.leastLooks(3),
@@ -135,23 +135,23 @@ public final class ExceptionsTest {
         }
         CHECKS.same("all of them together", Checks.whole(x), Checks.whole(same));
         CHECKS.throwsState("load", () -> {
-            FencedRows y = Checks.lived();
+            FencedRows y = Meadows.lived();
             y.append('x');
             return y;
         }, FencedRows::load);
         CHECKS.throwsState("undo", () -> {
-            FencedRows y = Checks.lived();
+            FencedRows y = Meadows.lived();
             y.restore(1);
             return y;
         }, FencedRows::undo);
         CHECKS.throwsState("the twelfth fence, with lies and sums", () -> {
-            FencedRows y = Checks.fullOfFences();
+            FencedRows y = Meadows.fullOfFences();
             y.lie(3, 1);
             y.tell();
             return y;
         }, y -> y.fence(20, true));
         CHECKS.throwsState("restore of an empty slot", () -> {
-            FencedRows y = Checks.front(2, 2);
+            FencedRows y = Meadows.front(2, 2);
             y.save(0);
             y.weigh(0, 9);
             return y;

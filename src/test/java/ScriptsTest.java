@@ -60,8 +60,8 @@ public final class ScriptsTest {
         s.in("Promise 26");
         s.holds("Simulates m turns on a copy of the state.", ScriptsTest::promise26OnACopy);
         s.holds("A long x starts as the seed.", ScriptsTest::promise26Seeds);
-        s.holds("Each turn first replaces x by x * 6364136223846793005L + 1442695040888963407L (with long overflow), and"
-                + " r = (int) (x >>> 33) is computed.", ScriptsTest::promise26Numbers);
+        s.holds("Each turn first replaces x by x * 6364136223846793005L + 1442695040888963407L (with long overflow),"
+                + " and r = (int) (x >>> 33) is computed.", ScriptsTest::promise26Numbers);
         s.holds("q is r / 8. By r % 8:", ScriptsTest::promise26Kinds);
         s.holds("0 and 1: away(q % 48, q / 48 % 3 is not 0).", ScriptsTest::promise26Away);
         s.holds("2: weigh(q % 48, 1 + q / 48 % 99).", ScriptsTest::promise26Weigh);
@@ -87,7 +87,7 @@ public final class ScriptsTest {
 
     /** Rows 0 to 3, which weigh 1, 1, 1 and 2, in a block of their own. */
     private static FencedRows meadow() {
-        return Checks.front(1, 1, 1, 2);
+        return Meadows.front(1, 1, 1, 2);
     }
 
     private static FencedRows untrusted() {
@@ -105,9 +105,9 @@ public final class ScriptsTest {
     }
 
     private static void promise25OnACopy() {
-        CHECKS.keeps("all succeed", Checks::lived, x -> x.runScript(3, 100014000050000L));
-        CHECKS.keeps("the first fails", Checks::lived, x -> x.runScript(3, 148014000050000L));
-        CHECKS.keeps("the last fails", Checks::lived, x -> x.runScript(3, 220013000450003L));
+        CHECKS.keeps("all succeed", Meadows::lived, x -> x.runScript(3, 100014000050000L));
+        CHECKS.keeps("the first fails", Meadows::lived, x -> x.runScript(3, 148014000050000L));
+        CHECKS.keeps("the last fails", Meadows::lived, x -> x.runScript(3, 220013000450003L));
         FencedRows x = meadow();
         CHECKS.is("a fence in a script", x.runScript(2, 2020180020L), 1);
         CHECKS.is("not in the next one", x.runScript(1, 80005L), 0);
@@ -167,7 +167,7 @@ public final class ScriptsTest {
         for (int v = 0; v <= 9; v++) {
             one("digit " + v, ScriptsTest::meadow, 30000 + v, v <= 4);
             one("digit " + v + " of block 1", ScriptsTest::meadow, 30100 + v, v <= 4);
-            one("digit " + v + " of block 11", Checks::fullOfFences, 31100 + v, v <= 4);
+            one("digit " + v + " of block 11", Meadows::fullOfFences, 31100 + v, v <= 4);
         }
     }
 
@@ -186,7 +186,7 @@ public final class ScriptsTest {
 
     private static void promise25Seek() {
         Checks.Maker last = () -> {
-            FencedRows x = Checks.front(1, 1, 1, 9);
+            FencedRows x = Meadows.front(1, 1, 1, 9);
             x.away(3, true);
             x.tell();
             return x;
@@ -260,8 +260,8 @@ public final class ScriptsTest {
         one("48 of 48", FencedRows::new, 80048, true);
         one("49 of 48", FencedRows::new, 80049, false);
         one("99 of 48", FencedRows::new, 80099, false);
-        one("1 of 1", Checks::fullOfFences, 81001, true);
-        one("37 of block 11", Checks::fullOfFences, 81137, true);
+        one("1 of 1", Meadows::fullOfFences, 81001, true);
+        one("37 of block 11", Meadows::fullOfFences, 81137, true);
     }
 
     private static FencedRows allMissed() {
@@ -290,9 +290,9 @@ public final class ScriptsTest {
         one("fence, no such place", ScriptsTest::meadow, 20001, false);
         one("fence, no such place", ScriptsTest::meadow, 24801, false);
         one("fence to take, no such place", ScriptsTest::meadow, 20000, false);
-        one("the twelfth fence", Checks::fullOfFences, 21201, false);
-        one("one of eleven again", Checks::fullOfFences, 21101, true);
-        one("none of eleven to take", Checks::fullOfFences, 21200, true);
+        one("the twelfth fence", Meadows::fullOfFences, 21201, false);
+        one("one of eleven again", Meadows::fullOfFences, 21101, true);
+        one("none of eleven to take", Meadows::fullOfFences, 21200, true);
         one("lie, no such block", ScriptsTest::meadow, 30202, false);
         one("lie, no such lie", ScriptsTest::meadow, 30005, false);
         one("seek, no sums", ScriptsTest::meadow, 50000, false);
@@ -310,8 +310,8 @@ public final class ScriptsTest {
             one("block " + k, ScriptsTest::meadow, 80000 + 100 * k, false);
             one("lie of block " + k, ScriptsTest::meadow, 30002 + 100 * k, false);
         }
-        one("block 12 of twelve", Checks::fullOfFences, 81200, false);
-        one("block 11 of twelve", Checks::fullOfFences, 81100, true);
+        one("block 12 of twelve", Meadows::fullOfFences, 81200, false);
+        one("block 11 of twelve", Meadows::fullOfFences, 81100, true);
         runs("a block that a fence of the script makes", ScriptsTest::meadow, 2, 2200180200L, NONE);
         runs("a block that is gone in the script", ScriptsTest::meadow, 2, 2040080100L, 1);
     }
@@ -356,7 +356,7 @@ public final class ScriptsTest {
     private static void promise25Decimal() {
         runs("row 10", ScriptsTest::untrusted, 3, 110015000071001L, NONE);
         runs("row 08", ScriptsTest::untrusted, 3, 108015000070801L, NONE);
-        one("block 10", Checks::fullOfFences, 81001, true);
+        one("block 10", Meadows::fullOfFences, 81001, true);
         one("10 rows of 4", ScriptsTest::meadow, 80010, false);
         one("10 rows of 44", ScriptsTest::meadow, 80110, true);
     }
@@ -366,9 +366,9 @@ public final class ScriptsTest {
         runs("10 of 10", ScriptsTest::meadow, 2, 4000040000L, NONE);
         runs("15 of 15", ScriptsTest::meadow, 3, 400004000040000L, NONE);
         runs("the greatest of 5", ScriptsTest::meadow, 1, 99999L, 0);
-        CHECKS.throwsArgument("6 of 5", Checks::lived, x -> x.runScript(1, 400000L));
-        CHECKS.throwsArgument("11 of 10", Checks::lived, x -> x.runScript(2, 40000400000L));
-        CHECKS.throwsArgument("16 of 15", Checks::lived, x -> x.runScript(3, 4000040000400000L));
+        CHECKS.throwsArgument("6 of 5", Meadows::lived, x -> x.runScript(1, 400000L));
+        CHECKS.throwsArgument("11 of 10", Meadows::lived, x -> x.runScript(2, 40000400000L));
+        CHECKS.throwsArgument("16 of 15", Meadows::lived, x -> x.runScript(3, 4000040000400000L));
     }
 
     private static void promise25Index() {
@@ -384,9 +384,9 @@ public final class ScriptsTest {
 
     private static void promise25NoCount() {
         for (int n : new int[] {0, 4, -1, LEAST, GREATEST}) {
-            CHECKS.throwsArgument("n " + n, Checks::lived, x -> x.runScript(n, 40000L));
-            CHECKS.throwsArgument("n " + n + ", script 0", Checks::lived, x -> x.runScript(n, 0L));
-            CHECKS.throwsArgument("n " + n + ", script -1", Checks::lived, x -> x.runScript(n, -1L));
+            CHECKS.throwsArgument("n " + n, Meadows::lived, x -> x.runScript(n, 40000L));
+            CHECKS.throwsArgument("n " + n + ", script 0", Meadows::lived, x -> x.runScript(n, 0L));
+            CHECKS.throwsArgument("n " + n + ", script -1", Meadows::lived, x -> x.runScript(n, -1L));
         }
     }
 
@@ -395,10 +395,10 @@ public final class ScriptsTest {
         for (int n = 1; n <= 3; n++) {
             int count = n;
             for (long script : new long[] {tooLong[n - 1], -1L, -40000L, Long.MAX_VALUE, Long.MIN_VALUE}) {
-                CHECKS.throwsArgument("script " + script + " of " + n, Checks::lived, x -> x.runScript(count, script));
+                CHECKS.throwsArgument("script " + script + " of " + n, Meadows::lived, x -> x.runScript(count, script));
             }
             long greatest = tooLong[n - 1] - 1;
-            CHECKS.throwsNothing("script " + greatest + " of " + n, Checks::lived, x -> x.runScript(count, greatest));
+            CHECKS.throwsNothing("script " + greatest + " of " + n, Meadows::lived, x -> x.runScript(count, greatest));
         }
     }
 
@@ -411,7 +411,7 @@ public final class ScriptsTest {
     }
 
     private static void promise26OnACopy() {
-        CHECKS.keeps("60 turns", Checks::lived, x -> x.simulate(5L, 60));
+        CHECKS.keeps("60 turns", Meadows::lived, x -> x.simulate(5L, 60));
         FencedRows x = Turns.meadow();
         CHECKS.is("the same again", x.simulate(5L, 60), Turns.meadow().simulate(5L, 60));
         CHECKS.is("and again", x.simulate(5L, 60), x.simulate(5L, 60));
@@ -515,7 +515,7 @@ public final class ScriptsTest {
     }
 
     private static FencedRows fullMeadow() {
-        FencedRows x = Checks.fullOfFences();
+        FencedRows x = Meadows.fullOfFences();
         x.trust(0);
         return x;
     }
@@ -598,7 +598,7 @@ public final class ScriptsTest {
 
     private static void promise26Throws() {
         for (int m : new int[] {0, 61, -1, LEAST, GREATEST}) {
-            CHECKS.throwsArgument("m " + m, Checks::lived, x -> x.simulate(1L, m));
+            CHECKS.throwsArgument("m " + m, Meadows::lived, x -> x.simulate(1L, m));
         }
     }
 }

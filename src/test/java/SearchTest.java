@@ -88,7 +88,7 @@ public final class SearchTest {
     /** The looks until each row of a block alone is found. */
     private static void looksForEach(String what, int way, int[] weights, int... due) {
         for (int r = 0; r < weights.length; r++) {
-            seeks(what + ", row " + r, told(away(Checks.front(weights), r)), way, due[r], r);
+            seeks(what + ", row " + r, told(away(Meadows.front(weights), r)), way, due[r], r);
         }
     }
 
@@ -100,15 +100,15 @@ public final class SearchTest {
             CHECKS.throwsNothing("looks by " + way, FencedRows::new, x -> x.looks(0, w, 0));
         }
         for (int way : NO_WAYS) {
-            CHECKS.throwsArgument("seek by " + way, Checks::lived, x -> x.seek(way));
-            CHECKS.throwsArgument("ifSought by " + way, Checks::lived, x -> x.ifSought(way, 0));
-            CHECKS.throwsArgument("looks by " + way, Checks::lived, x -> x.looks(0, way, 0));
+            CHECKS.throwsArgument("seek by " + way, Meadows::lived, x -> x.seek(way));
+            CHECKS.throwsArgument("ifSought by " + way, Meadows::lived, x -> x.ifSought(way, 0));
+            CHECKS.throwsArgument("looks by " + way, Meadows::lived, x -> x.looks(0, way, 0));
         }
     }
 
     /** The last of four rows, which weighs 9 and was taken three times. */
     private static FencedRows uneven() {
-        FencedRows x = untrusted(away(Checks.front(1, 1, 1, 9), 3));
+        FencedRows x = untrusted(away(Meadows.front(1, 1, 1, 9), 3));
         x.seek(0);
         x.seek(0);
         x.seek(0);
@@ -124,7 +124,7 @@ public final class SearchTest {
     private static void valuesOfWay1() {
         CHECKS.answers("the most", SearchTest::uneven, x -> x.looks(0, 1, 0), 3);
         CHECKS.answers("all", SearchTest::uneven, x -> x.looks(0, 1, 1), 2 + 3 + 3 + 1 * 4);
-        FencedRows alike = Checks.front(5, 5, 5, 5);
+        FencedRows alike = Meadows.front(5, 5, 5, 5);
         CHECKS.is("weights that are alike", alike.looks(0, 1, 1), 8);
     }
 
@@ -132,7 +132,7 @@ public final class SearchTest {
     private static void valuesOfWay2() {
         CHECKS.answers("1, 1, 1 and 4, the most", SearchTest::uneven, x -> x.looks(0, 2, 0), 3);
         CHECKS.answers("1, 1, 1 and 4, all", SearchTest::uneven, x -> x.looks(0, 2, 1), 2 + 3 + 3 + 1 * 4);
-        CHECKS.answers("no losses", () -> Checks.front(1, 1, 1, 9), x -> x.looks(0, 2, 1), 8);
+        CHECKS.answers("no losses", () -> Meadows.front(1, 1, 1, 9), x -> x.looks(0, 2, 1), 8);
     }
 
     private static void twoRows() {
@@ -159,50 +159,50 @@ public final class SearchTest {
     }
 
     private static void lackingByTheSum() {
-        seeks("nobody away", told(Checks.front(1, 1, 1, 1)), 0, 0);
-        seeks("one away", told(away(Checks.front(1, 1, 1, 1), 1)), 0, 2, 1);
-        seeks("nobody away, a lie of -1", told(lying(-1, Checks.front(1, 1, 1, 1))), 0, 2, 3);
-        FencedRows heavier = told(Checks.front(1, 1, 1, 1));
+        seeks("nobody away", told(Meadows.front(1, 1, 1, 1)), 0, 0);
+        seeks("one away", told(away(Meadows.front(1, 1, 1, 1), 1)), 0, 2, 1);
+        seeks("nobody away, a lie of -1", told(lying(-1, Meadows.front(1, 1, 1, 1))), 0, 2, 3);
+        FencedRows heavier = told(Meadows.front(1, 1, 1, 1));
         heavier.weigh(2, 3);
         seeks("the book is that of now", heavier, 0, 3);
-        FencedRows blocks = away(Checks.front(1, 1, 1, 1), 0, 5);
+        FencedRows blocks = away(Meadows.front(1, 1, 1, 1), 0, 5);
         blocks.fence(6, true);
         seeks("one in each of two blocks", told(blocks), 0, 2 + 1, 0, 5);
     }
 
     private static void lackingByALook() {
-        seeks("nobody away in two blocks", untrusted(Checks.front(1, 1, 1, 1)), 0, 2);
-        seeks("one away", untrusted(away(Checks.front(1, 1, 1, 1), 1)), 0, 2 + 2, 1);
-        seeks("a whole block", untrusted(away(Checks.front(1, 1), 0, 1)), 0, 2, 0, 1);
-        seeks("a lie that is told", untrusted(told(lying(-2, Checks.front(1, 1)))), 0, 2);
-        seeks("a sum that is out of date", untrusted(away(told(Checks.front(1, 1)), 1)), 0, 2 + 1, 1);
+        seeks("nobody away in two blocks", untrusted(Meadows.front(1, 1, 1, 1)), 0, 2);
+        seeks("one away", untrusted(away(Meadows.front(1, 1, 1, 1), 1)), 0, 2 + 2, 1);
+        seeks("a whole block", untrusted(away(Meadows.front(1, 1), 0, 1)), 0, 2, 0, 1);
+        seeks("a lie that is told", untrusted(told(lying(-2, Meadows.front(1, 1)))), 0, 2);
+        seeks("a sum that is out of date", untrusted(away(told(Meadows.front(1, 1)), 1)), 0, 2 + 1, 1);
         seeks("one block", untrusted(new FencedRows()), 0, 1);
-        seeks("twelve blocks", untrusted(Checks.fullOfFences()), 2, 12);
+        seeks("twelve blocks", untrusted(Meadows.fullOfFences()), 2, 12);
     }
 
     private static void aboveZero() {
-        seeks("lacking 1", told(lying(-1, Checks.front(3, 3))), 0, 2);
-        seeks("lacking 0", told(Checks.front(3, 3)), 0, 0);
-        seeks("lacking -1", told(lying(1, Checks.front(3, 3))), 0, 0);
-        seeks("lacking -2", told(lying(2, Checks.front(3, 3))), 0, 0);
-        seeks("lacking 0 by a lie", told(lying(1, away(Checks.front(1, 3), 0))), 0, 0);
-        seeks("lacking -1 by a lie", told(lying(2, away(Checks.front(1, 3), 0))), 0, 0);
-        FencedRows lighter = told(Checks.front(5, 3));
+        seeks("lacking 1", told(lying(-1, Meadows.front(3, 3))), 0, 2);
+        seeks("lacking 0", told(Meadows.front(3, 3)), 0, 0);
+        seeks("lacking -1", told(lying(1, Meadows.front(3, 3))), 0, 0);
+        seeks("lacking -2", told(lying(2, Meadows.front(3, 3))), 0, 0);
+        seeks("lacking 0 by a lie", told(lying(1, away(Meadows.front(1, 3), 0))), 0, 0);
+        seeks("lacking -1 by a lie", told(lying(2, away(Meadows.front(1, 3), 0))), 0, 0);
+        FencedRows lighter = told(Meadows.front(5, 3));
         lighter.weigh(0, 1);
         seeks("lacking -4, lighter since then", away(lighter, 0), 0, 0);
-        seeks("untrusted, lacking 0", untrusted(Checks.front(3, 3)), 0, 2);
+        seeks("untrusted, lacking 0", untrusted(Meadows.front(3, 3)), 0, 2);
     }
 
     private static void justTheBook() {
-        seeks("a block", told(away(Checks.front(1, 1, 1, 1), 0, 1, 2, 3)), 0, 0, 0, 1, 2, 3);
-        seeks("a block, come back", back(told(away(Checks.front(1, 1), 0, 1)), 0, 1), 0, 0, 0, 1);
+        seeks("a block", told(away(Meadows.front(1, 1, 1, 1), 0, 1, 2, 3)), 0, 0, 0, 1, 2, 3);
+        seeks("a block, come back", back(told(away(Meadows.front(1, 1), 0, 1)), 0, 1), 0, 0, 0, 1);
         seeks("all rows", told(away(new FencedRows(), allRows())), 0, 0, boxed(allRows()));
-        seeks("the left", told(away(Checks.front(1, 1, 1, 1), 0, 1)), 0, 1, 0, 1);
-        seeks("the right", told(away(Checks.front(1, 1, 1, 1), 2, 3)), 0, 1, 2, 3);
-        seeks("one row", told(away(Checks.front(5), 0)), 0, 0, 0);
-        seeks("one row, a lie", told(lying(-1, Checks.front(1))), 0, 0, 0);
-        seeks("one less than the book", told(lying(1, away(Checks.front(1, 1, 1, 1), 0, 1, 2, 3))), 0, 2, 0, 1, 2);
-        seeks("one more than the book", told(lying(-1, away(Checks.front(1, 1, 1, 1), 0, 1, 2, 3))), 0, 3, 0, 1, 2, 3);
+        seeks("the left", told(away(Meadows.front(1, 1, 1, 1), 0, 1)), 0, 1, 0, 1);
+        seeks("the right", told(away(Meadows.front(1, 1, 1, 1), 2, 3)), 0, 1, 2, 3);
+        seeks("one row", told(away(Meadows.front(5), 0)), 0, 0, 0);
+        seeks("one row, a lie", told(lying(-1, Meadows.front(1))), 0, 0, 0);
+        seeks("one less than the book", told(lying(1, away(Meadows.front(1, 1, 1, 1), 0, 1, 2, 3))), 0, 2, 0, 1, 2);
+        seeks("one more than the book", told(lying(-1, away(Meadows.front(1, 1, 1, 1), 0, 1, 2, 3))), 0, 3, 0, 1, 2, 3);
     }
 
     private static int[] allRows() {
@@ -218,56 +218,56 @@ public final class SearchTest {
     }
 
     private static void oneRow() {
-        seeks("there, less than it weighs", told(lying(-1, Checks.front(2))), 0, 1);
-        seeks("away, less than it weighs", away(told(lying(-1, Checks.front(2))), 0), 0, 1, 0);
-        seeks("there, more than it weighs", told(lying(-2, Checks.front(1))), 0, 1);
-        seeks("away, more than it weighs", told(lying(-2, away(Checks.front(1), 0))), 0, 1, 0);
-        seeks("behind a halving, there", told(lying(-1, Checks.front(1, 1, 1, 2))), 0, 3);
-        seeks("behind a halving, away", away(told(lying(-1, Checks.front(1, 1, 1, 2))), 3), 0, 3, 3);
+        seeks("there, less than it weighs", told(lying(-1, Meadows.front(2))), 0, 1);
+        seeks("away, less than it weighs", away(told(lying(-1, Meadows.front(2))), 0), 0, 1, 0);
+        seeks("there, more than it weighs", told(lying(-2, Meadows.front(1))), 0, 1);
+        seeks("away, more than it weighs", told(lying(-2, away(Meadows.front(1), 0))), 0, 1, 0);
+        seeks("behind a halving, there", told(lying(-1, Meadows.front(1, 1, 1, 2))), 0, 3);
+        seeks("behind a halving, away", away(told(lying(-1, Meadows.front(1, 1, 1, 2))), 3), 0, 3, 3);
     }
 
     private static void oneLookAtTheLeft() {
-        seeks("two rows, the right", told(away(Checks.front(1, 1), 1)), 0, 1, 1);
-        seeks("two rows, the left", told(away(Checks.front(1, 1), 0)), 0, 1, 0);
-        seeks("four rows, one of each half", told(away(Checks.front(1, 1, 1, 1), 1, 2)), 0, 3, 1, 2);
+        seeks("two rows, the right", told(away(Meadows.front(1, 1), 1)), 0, 1, 1);
+        seeks("two rows, the left", told(away(Meadows.front(1, 1), 0)), 0, 1, 0);
+        seeks("four rows, one of each half", told(away(Meadows.front(1, 1, 1, 1), 1, 2)), 0, 3, 1, 2);
         seeks("48 rows", told(away(new FencedRows(), 47)), 0, 6, 47);
     }
 
     private static void leftWithTheDifference() {
-        seeks("nothing lacks there", told(away(Checks.front(1, 1, 1, 1), 2)), 0, 2, 2);
-        seeks("something lacks there", told(away(Checks.front(1, 1, 1, 1), 0)), 0, 2, 0);
-        seeks("less than all that is lacking", told(away(Checks.front(1, 1, 1, 1), 1, 2, 3)), 0, 2, 1, 2, 3);
-        seeks("another than was told", away(back(told(away(Checks.front(1, 1, 1, 1), 3)), 3), 0), 0, 2, 0);
+        seeks("nothing lacks there", told(away(Meadows.front(1, 1, 1, 1), 2)), 0, 2, 2);
+        seeks("something lacks there", told(away(Meadows.front(1, 1, 1, 1), 0)), 0, 2, 0);
+        seeks("less than all that is lacking", told(away(Meadows.front(1, 1, 1, 1), 1, 2, 3)), 0, 2, 1, 2, 3);
+        seeks("another than was told", away(back(told(away(Meadows.front(1, 1, 1, 1), 3)), 3), 0), 0, 2, 0);
     }
 
     private static void rightWithTheRest() {
-        FencedRows less = away(told(away(Checks.front(1, 1, 1, 1), 3)), 0, 1);
+        FencedRows less = away(told(away(Meadows.front(1, 1, 1, 1), 3)), 0, 1);
         seeks("less than the difference is lacking", less, 0, 1, 0, 1);
         CHECKS.is("the right is not searched", less.about(8), 1);
-        FencedRows equal = away(back(told(away(Checks.front(1, 1, 1, 1), 3)), 3), 0);
+        FencedRows equal = away(back(told(away(Meadows.front(1, 1, 1, 1), 3)), 3), 0);
         away(equal, 2);
         seeks("just the difference is lacking", equal, 0, 2, 0);
         CHECKS.is("the right is not searched then", equal.about(8), 1);
-        seeks("1 more than the difference", told(away(Checks.front(1, 1, 1, 1), 0, 3)), 0, 3, 0, 3);
-        seeks("with the rest, not with all", told(away(Checks.front(1, 1, 1, 2), 0, 3)), 0, 3, 0, 3);
+        seeks("1 more than the difference", told(away(Meadows.front(1, 1, 1, 1), 0, 3)), 0, 3, 0, 3);
+        seeks("with the rest, not with all", told(away(Meadows.front(1, 1, 1, 2), 0, 3)), 0, 3, 0, 3);
     }
 
     private static void looksTellWhatIsSo() {
-        FencedRows hidden = told(lying(1, away(Checks.front(1, 1, 1, 1), 1)));
+        FencedRows hidden = told(lying(1, away(Meadows.front(1, 1, 1, 1), 1)));
         seeks("a lie that hides a row", hidden, 0, 0);
         CHECKS.is("it is missed", hidden.about(8), 1);
-        FencedRows late = away(told(Checks.front(1, 1, 1, 1)), 2);
+        FencedRows late = away(told(Meadows.front(1, 1, 1, 1)), 2);
         seeks("away since the telling", late, 0, 0);
         CHECKS.is("it is missed, too", late.about(8), 1);
-        FencedRows early = back(told(away(Checks.front(1, 1, 1, 1), 2)), 2);
+        FencedRows early = back(told(away(Meadows.front(1, 1, 1, 1), 2)), 2);
         seeks("back since the telling", early, 0, 2, 3);
         CHECKS.is("another is taken wrongly", early.about(7), 1);
-        FencedRows moved = away(back(told(away(Checks.front(1, 1, 1, 1), 3)), 3), 1);
+        FencedRows moved = away(back(told(away(Meadows.front(1, 1, 1, 1), 3)), 3), 1);
         seeks("another away than at the telling", moved, 0, 2, 1);
     }
 
     private static void lossesBehindASearch() {
-        FencedRows x = told(away(Checks.front(1, 1, 1, 1), 1));
+        FencedRows x = told(away(Meadows.front(1, 1, 1, 1), 1));
         x.ifSought(0, 0);
         x.bestWay();
         x.runScript(2, 4000050000L);
@@ -278,13 +278,13 @@ public final class SearchTest {
         x.seek(0);
         CHECKS.is("taken twice", x.rowOf(1, 2), 2);
         CHECKS.is("the others", x.about(10), 2);
-        FencedRows wrongly = told(lying(-1, Checks.front(1, 1, 1, 1)));
+        FencedRows wrongly = told(lying(-1, Meadows.front(1, 1, 1, 1)));
         wrongly.seek(0);
         CHECKS.is("taken wrongly", wrongly.rowOf(3, 2), 1);
-        FencedRows behind = told(away(Checks.front(1, 1, 1, 1), 3));
+        FencedRows behind = told(away(Meadows.front(1, 1, 1, 1), 3));
         int before = behind.ifSought(2, 0);
         CHECKS.is("the values of way 2 are those ahead of the search", behind.seek(2), before);
-        FencedRows none = told(Checks.front(1, 1, 1, 1));
+        FencedRows none = told(Meadows.front(1, 1, 1, 1));
         none.seek(0);
         CHECKS.is("nobody is taken", none.about(10), 0);
     }
@@ -300,15 +300,15 @@ public final class SearchTest {
     }
 
     private static void searchesOfATextCount() {
-        FencedRows x = Checks.loaded("Mf04a01nk0");
+        FencedRows x = Meadows.loaded("Mf04a01nk0");
         CHECKS.is("looks", x.about(5), 2);
         CHECKS.is("taken", x.about(6), 1);
         CHECKS.is("the row", x.rowOf(1, 4), 1);
         CHECKS.is("its losses", x.rowOf(1, 2), 1);
-        FencedRows more = Checks.loaded("Mf04a01nk0a40k0k1");
+        FencedRows more = Meadows.loaded("Mf04a01nk0a40k0k1");
         CHECKS.is("looks of three", more.about(5), 2 + 2 + 2);
         CHECKS.is("losses of three", more.rowOf(1, 2), 3);
         CHECKS.is("missed in the latest", more.about(8), 1);
-        CHECKS.is("left out, it does not count", Checks.loaded("Ma01k0").about(5), 0);
+        CHECKS.is("left out, it does not count", Meadows.loaded("Ma01k0").about(5), 0);
     }
 }

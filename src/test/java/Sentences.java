@@ -94,7 +94,7 @@ final class Sentences {
         return document().keySet();
     }
 
-    /** The words from the Terms to the last promise by their sections, each with single blanks and no signs of Markdown. */
+    /** The words from the Terms to the last promise by their sections, with single blanks, and without Markdown. */
     private static Map<String, String> document() throws IOException {
         Map<String, List<String>> lines = new LinkedHashMap<>();
         String section = "";

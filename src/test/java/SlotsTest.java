@@ -29,7 +29,7 @@ public final class SlotsTest {
 
     /** Another meadow than lived(), with five blocks. */
     private static FencedRows other() {
-        FencedRows x = Checks.typed("Ma03");
+        FencedRows x = Meadows.typed("Ma03");
         x.spread(4);
         x.weigh(47, 99);
         x.away(10, true);
@@ -41,8 +41,8 @@ public final class SlotsTest {
     }
 
     private static void promise27Stores() {
-        FencedRows x = Checks.lived();
-        Object due = Checks.seen(Checks.lived());
+        FencedRows x = Meadows.lived();
+        Object due = Checks.seen(Meadows.lived());
         x.save(1);
         x.spread(9);
         x.trust(1);
@@ -78,13 +78,13 @@ public final class SlotsTest {
 
     private static void promise27Blocks() {
         CHECKS.answers("of a new object", FencedRows::new, x -> x.save(1), 1);
-        CHECKS.answers("of three", Checks::lived, x -> x.save(0), 3);
-        CHECKS.answers("of twelve", Checks::fullOfFences, x -> x.save(0), 12);
+        CHECKS.answers("of three", Meadows::lived, x -> x.save(0), 3);
+        CHECKS.answers("of twelve", Meadows::fullOfFences, x -> x.save(0), 12);
     }
 
     private static void promise27NoSlot() {
         for (int slot : NO_SLOTS) {
-            CHECKS.throwsIndex("slot " + slot, Checks::lived, x -> x.save(slot));
+            CHECKS.throwsIndex("slot " + slot, Meadows::lived, x -> x.save(slot));
             CHECKS.throwsIndex("slot " + slot + " of a new object", FencedRows::new, x -> x.save(slot));
         }
     }
@@ -155,9 +155,9 @@ public final class SlotsTest {
     }
 
     private static void promise28Slots() {
-        CHECKS.answers("slot 0", Checks::lived, x -> x.restore(0) * 0 + x.about(9), 1);
-        CHECKS.answers("slot 1", Checks::lived, x -> x.restore(1) * 0 + x.about(9), 0);
-        CHECKS.answers("one and the other", Checks::lived, x -> x.restore(1) + x.restore(0) + x.about(9), 3 + 3 + 1);
+        CHECKS.answers("slot 0", Meadows::lived, x -> x.restore(0) * 0 + x.about(9), 1);
+        CHECKS.answers("slot 1", Meadows::lived, x -> x.restore(1) * 0 + x.about(9), 0);
+        CHECKS.answers("one and the other", Meadows::lived, x -> x.restore(1) + x.restore(0) + x.about(9), 3 + 3 + 1);
     }
 
     private static void promise28Blocks() {
@@ -173,7 +173,7 @@ public final class SlotsTest {
 
     private static void promise28NoSlot() {
         for (int slot : NO_SLOTS) {
-            CHECKS.throwsIndex("slot " + slot, Checks::lived, x -> x.restore(slot));
+            CHECKS.throwsIndex("slot " + slot, Meadows::lived, x -> x.restore(slot));
             CHECKS.throwsIndex("slot " + slot + " of a new object", FencedRows::new, x -> x.restore(slot));
         }
     }
@@ -197,15 +197,15 @@ public final class SlotsTest {
         for (int slot = 0; slot <= 1; slot++) {
             int s = slot;
             CHECKS.throwsState("slot " + slot, () -> {
-                FencedRows x = Checks.lived();
+                FencedRows x = Meadows.lived();
                 x.load();
                 return x;
             }, x -> x.restore(s));
-            FencedRows x = Checks.lived();
+            FencedRows x = Meadows.lived();
             x.load();
             x.save(slot);
             CHECKS.is("saved in slot " + slot + " since then", x.restore(slot), 3);
-            FencedRows failed = Checks.lived();
+            FencedRows failed = Meadows.lived();
             failed.append('x');
             CHECKS.same("a load that throws", Checks.thrown(failed, FencedRows::load), STATE);
             CHECKS.is("leaves slot " + slot, failed.restore(slot), 3);

@@ -91,39 +91,31 @@ public final class StateTest {
 
     // ---- promise 6
 
-    private static FencedRows allAway() {
-        FencedRows x = new FencedRows();
-        for (int r = 0; r < 48; r++) {
-            x.away(r, true);
-        }
-        return x;
-    }
-
     private static void promise6Blocks() {
         CHECKS.answers("no fence", FencedRows::new, x -> x.about(0), 1);
-        CHECKS.answers("one fence", () -> Checks.front(1), x -> x.about(0), 2);
-        CHECKS.answers("eleven fences", Checks::fullOfFences, x -> x.about(0), 12);
+        CHECKS.answers("one fence", () -> Meadows.front(1), x -> x.about(0), 2);
+        CHECKS.answers("eleven fences", Meadows::fullOfFences, x -> x.about(0), 12);
     }
 
     private static void promise6Away() {
         CHECKS.answers("none", FencedRows::new, x -> x.about(1), 0);
-        CHECKS.answers("all", StateTest::allAway, x -> x.about(1), 48);
-        FencedRows x = allAway();
+        CHECKS.answers("all", Meadows::allAway, x -> x.about(1), 48);
+        FencedRows x = Meadows.allAway();
         x.away(0, false);
         x.away(47, false);
         CHECKS.is("all but two", x.about(1), 46);
     }
 
     private static void promise6Book() {
-        CHECKS.answers("all away", StateTest::allAway, x -> x.about(2), 48);
-        FencedRows x = Checks.front(99, 2);
+        CHECKS.answers("all away", Meadows::allAway, x -> x.about(2), 48);
+        FencedRows x = Meadows.front(99, 2);
         x.weigh(47, 50);
         CHECKS.is("the ends are heavy", x.about(2), 48 + 98 + 1 + 49);
     }
 
     private static void promise6Field() {
-        CHECKS.answers("all away", StateTest::allAway, x -> x.about(3), 0);
-        FencedRows x = Checks.front(99, 2);
+        CHECKS.answers("all away", Meadows::allAway, x -> x.about(3), 0);
+        FencedRows x = Meadows.front(99, 2);
         x.weigh(47, 50);
         CHECKS.is("all there", x.about(3), 48 + 98 + 1 + 49);
         x.away(0, true);
@@ -149,7 +141,7 @@ public final class StateTest {
 
     /** Row 1 of four is away and told, by two looks. */
     private static FencedRows searched() {
-        FencedRows x = Checks.front(1, 1, 1, 1);
+        FencedRows x = Meadows.front(1, 1, 1, 1);
         x.away(1, true);
         x.tell();
         x.seek(0);
@@ -172,9 +164,9 @@ public final class StateTest {
     }
 
     private static void promise6Taken() {
-        CHECKS.answers("ahead of the first one", StateTest::allAway, x -> x.about(6), 0);
+        CHECKS.answers("ahead of the first one", Meadows::allAway, x -> x.about(6), 0);
         CHECKS.answers("one", StateTest::searched, x -> x.about(6), 1);
-        FencedRows x = allAway();
+        FencedRows x = Meadows.allAway();
         x.tell();
         x.seek(0);
         CHECKS.is("all", x.about(6), 48);
@@ -188,7 +180,7 @@ public final class StateTest {
 
     /** Of the first four rows one is taken wrongly by a lie; a row behind them went away since the telling. */
     private static FencedRows mistaken() {
-        FencedRows x = Checks.front(1, 1, 1, 1);
+        FencedRows x = Meadows.front(1, 1, 1, 1);
         x.lie(0, -1);
         x.tell();
         x.away(20, true);
@@ -197,10 +189,10 @@ public final class StateTest {
     }
 
     private static void promise6Wrong() {
-        CHECKS.answers("ahead of the first one", StateTest::allAway, x -> x.about(7), 0);
+        CHECKS.answers("ahead of the first one", Meadows::allAway, x -> x.about(7), 0);
         CHECKS.answers("none", StateTest::searched, x -> x.about(7), 0);
         CHECKS.answers("one", StateTest::mistaken, x -> x.about(7), 1);
-        FencedRows x = allAway();
+        FencedRows x = Meadows.allAway();
         x.tell();
         for (int r = 0; r < 48; r++) {
             x.away(r, false);
@@ -210,7 +202,7 @@ public final class StateTest {
     }
 
     private static void promise6Missed() {
-        CHECKS.answers("ahead of the first one", StateTest::allAway, x -> x.about(8), 0);
+        CHECKS.answers("ahead of the first one", Meadows::allAway, x -> x.about(8), 0);
         CHECKS.answers("none", StateTest::searched, x -> x.about(8), 0);
         CHECKS.answers("one", StateTest::mistaken, x -> x.about(8), 1);
         FencedRows x = new FencedRows();
@@ -247,9 +239,9 @@ public final class StateTest {
     }
 
     private static void promise6Losses() {
-        CHECKS.answers("none so far", StateTest::allAway, x -> x.about(10), 0);
+        CHECKS.answers("none so far", Meadows::allAway, x -> x.about(10), 0);
         CHECKS.answers("one", StateTest::mistaken, x -> x.about(10), 1);
-        FencedRows x = allAway();
+        FencedRows x = Meadows.allAway();
         x.trust(0);
         for (int i = 1; i <= 100; i++) {
             x.seek(0);
@@ -260,10 +252,10 @@ public final class StateTest {
     private static void promise6Throws() {
         for (int what = 0; what <= 10; what++) {
             int w = what;
-            CHECKS.throwsNothing("about(" + what + ")", Checks::lived, x -> x.about(w));
+            CHECKS.throwsNothing("about(" + what + ")", Meadows::lived, x -> x.about(w));
         }
         for (int wrong : new int[] {-1, 11, LEAST, GREATEST}) {
-            CHECKS.throwsArgument("about(" + wrong + ")", Checks::lived, x -> x.about(wrong));
+            CHECKS.throwsArgument("about(" + wrong + ")", Meadows::lived, x -> x.about(wrong));
         }
     }
 
@@ -324,16 +316,16 @@ public final class StateTest {
         for (int i = 0; i < rows.length; i++) {
             CHECKS.is("row " + rows[i], x.rowOf(rows[i], 3), blocks[i]);
         }
-        CHECKS.answers("the last row with eleven fences", Checks::fullOfFences, y -> y.rowOf(47, 3), 11);
+        CHECKS.answers("the last row with eleven fences", Meadows::fullOfFences, y -> y.rowOf(47, 3), 11);
     }
 
     private static void promise7Taken() {
-        CHECKS.answers("ahead of the first search", StateTest::allAway, x -> x.rowOf(0, 4), 0);
+        CHECKS.answers("ahead of the first search", Meadows::allAway, x -> x.rowOf(0, 4), 0);
         CHECKS.answers("taken", StateTest::searched, x -> x.rowOf(1, 4), 1);
         CHECKS.answers("not taken", StateTest::searched, x -> x.rowOf(0, 4), 0);
         CHECKS.answers("taken wrongly", StateTest::mistaken, x -> x.rowOf(3, 4), 1);
         CHECKS.answers("missed", StateTest::mistaken, x -> x.rowOf(20, 4), 0);
-        FencedRows x = allAway();
+        FencedRows x = Meadows.allAway();
         x.tell();
         x.seek(0);
         CHECKS.is("the first row", x.rowOf(0, 4), 1);
@@ -350,17 +342,17 @@ public final class StateTest {
         for (int wrong : new int[] {-1, 48, LEAST, GREATEST}) {
             for (int what = 0; what <= 4; what++) {
                 int w = what;
-                CHECKS.throwsIndex("rowOf(" + wrong + ", " + what + ")", Checks::lived, x -> x.rowOf(wrong, w));
+                CHECKS.throwsIndex("rowOf(" + wrong + ", " + what + ")", Meadows::lived, x -> x.rowOf(wrong, w));
             }
-            CHECKS.throwsIndex("rowOf(" + wrong + ", 5)", Checks::lived, x -> x.rowOf(wrong, 5));
-            CHECKS.throwsIndex("rowOf(" + wrong + ", -1)", Checks::lived, x -> x.rowOf(wrong, -1));
+            CHECKS.throwsIndex("rowOf(" + wrong + ", 5)", Meadows::lived, x -> x.rowOf(wrong, 5));
+            CHECKS.throwsIndex("rowOf(" + wrong + ", -1)", Meadows::lived, x -> x.rowOf(wrong, -1));
         }
     }
 
     private static void promise7NoNumber() {
         for (int wrong : new int[] {-1, 5, LEAST, GREATEST}) {
-            CHECKS.throwsArgument("rowOf(0, " + wrong + ")", Checks::lived, x -> x.rowOf(0, wrong));
-            CHECKS.throwsArgument("rowOf(47, " + wrong + ")", Checks::lived, x -> x.rowOf(47, wrong));
+            CHECKS.throwsArgument("rowOf(0, " + wrong + ")", Meadows::lived, x -> x.rowOf(0, wrong));
+            CHECKS.throwsArgument("rowOf(47, " + wrong + ")", Meadows::lived, x -> x.rowOf(47, wrong));
         }
     }
 
@@ -368,7 +360,7 @@ public final class StateTest {
 
     /** Blocks of the rows 0 to 3, 4 to 45, and 46 to 47. */
     private static FencedRows threeBlocks() {
-        FencedRows x = Checks.front(1, 1, 1, 2);
+        FencedRows x = Meadows.front(1, 1, 1, 2);
         x.fence(46, true);
         x.away(3, true);
         x.lie(0, -2);
@@ -384,7 +376,7 @@ public final class StateTest {
     }
 
     private static void promise8Blocks() {
-        FencedRows x = Checks.fullOfFences();
+        FencedRows x = Meadows.fullOfFences();
         for (int k = 0; k <= 11; k++) {
             CHECKS.is("block " + k, x.blockOf(k, 0), k);
         }
@@ -398,8 +390,8 @@ public final class StateTest {
     private static void promise8Rows() {
         ofBlocks(1, 4, 42, 2);
         CHECKS.answers("the only block", FencedRows::new, x -> x.blockOf(0, 1), 48);
-        CHECKS.answers("one row", Checks::fullOfFences, x -> x.blockOf(10, 1), 1);
-        CHECKS.answers("the last block", Checks::fullOfFences, x -> x.blockOf(11, 1), 37);
+        CHECKS.answers("one row", Meadows::fullOfFences, x -> x.blockOf(10, 1), 1);
+        CHECKS.answers("the last block", Meadows::fullOfFences, x -> x.blockOf(11, 1), 37);
     }
 
     private static void promise8Book() {
@@ -408,7 +400,7 @@ public final class StateTest {
 
     private static void promise8Field() {
         ofBlocks(3, 3, 42, 2);
-        CHECKS.answers("all away", StateTest::allAway, x -> x.blockOf(0, 3), 0);
+        CHECKS.answers("all away", Meadows::allAway, x -> x.blockOf(0, 3), 0);
     }
 
     private static void promise8Lie() {
@@ -442,7 +434,7 @@ public final class StateTest {
             CHECKS.throwsIndex("blockOf(" + wrong + ", 6)", StateTest::threeBlocks, x -> x.blockOf(wrong, 6));
         }
         CHECKS.throwsIndex("block 1 of one", FencedRows::new, x -> x.blockOf(1, 0));
-        CHECKS.throwsIndex("block 12 of twelve", Checks::fullOfFences, x -> x.blockOf(12, 0));
+        CHECKS.throwsIndex("block 12 of twelve", Meadows::fullOfFences, x -> x.blockOf(12, 0));
     }
 
     private static void promise8NoNumber() {

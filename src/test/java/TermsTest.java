@@ -38,7 +38,7 @@ public final class TermsTest {
     }
 
     private static void whatIsTold() {
-        FencedRows x = Checks.front(1, 1, 1, 9);
+        FencedRows x = Meadows.front(1, 1, 1, 9);
         x.away(3, true);
         x.tell();
         CHECKS.is("looks of a search", x.ifSought(0, 0), 2);
@@ -50,10 +50,10 @@ public final class TermsTest {
     }
 
     private static void changesAreUndone() {
-        FencedRows x = Checks.lived();
+        FencedRows x = Meadows.lived();
         x.away(9, true);
         x.undo();
-        CHECKS.same("behind undo", Checks.seen(x), Checks.seen(Checks.lived()));
+        CHECKS.same("behind undo", Checks.seen(x), Checks.seen(Meadows.lived()));
     }
 
     /** By turns, whose numbers are divided; the other call is what another rounding would bring. */
@@ -78,9 +78,9 @@ public final class TermsTest {
             CHECKS.is("weight of row " + r, x.rowOf(r, 0), r + 1);
         }
         for (int r : new int[] {-1, 48, LEAST, GREATEST}) {
-            CHECKS.throwsIndex("rowOf, row " + r, Checks::lived, y -> y.rowOf(r, 0));
-            CHECKS.throwsIndex("weigh, row " + r, Checks::lived, y -> y.weigh(r, 1));
-            CHECKS.throwsIndex("away, row " + r, Checks::lived, y -> y.away(r, true));
+            CHECKS.throwsIndex("rowOf, row " + r, Meadows::lived, y -> y.rowOf(r, 0));
+            CHECKS.throwsIndex("weigh, row " + r, Meadows::lived, y -> y.weigh(r, 1));
+            CHECKS.throwsIndex("away, row " + r, Meadows::lived, y -> y.away(r, true));
         }
     }
 
@@ -93,8 +93,8 @@ public final class TermsTest {
             x.weigh(7, w);
             CHECKS.is("weight " + w, x.rowOf(7, 0), w);
         }
-        CHECKS.throwsArgument("weight 0", Checks::lived, y -> y.weigh(7, 0));
-        CHECKS.throwsArgument("weight 100", Checks::lived, y -> y.weigh(7, 100));
+        CHECKS.throwsArgument("weight 0", Meadows::lived, y -> y.weigh(7, 0));
+        CHECKS.throwsArgument("weight 100", Meadows::lived, y -> y.weigh(7, 100));
     }
 
     private static void thereAtFirst() {
@@ -124,8 +124,8 @@ public final class TermsTest {
             CHECKS.is("the row behind it", x.rowOf(r, 3), 1);
         }
         for (int r : new int[] {0, 48, -1, LEAST, GREATEST}) {
-            CHECKS.throwsIndex("a fence ahead of " + r, Checks::lived, x -> x.fence(r, true));
-            CHECKS.throwsIndex("no fence ahead of " + r, Checks::lived, x -> x.fence(r, false));
+            CHECKS.throwsIndex("a fence ahead of " + r, Meadows::lived, x -> x.fence(r, true));
+            CHECKS.throwsIndex("no fence ahead of " + r, Meadows::lived, x -> x.fence(r, false));
         }
     }
 
@@ -135,8 +135,8 @@ public final class TermsTest {
         for (int i = 1; i <= 11; i++) {
             CHECKS.is("blocks with " + i, x.fence(4 * i, true), i + 1);
         }
-        CHECKS.throwsState("the twelfth", Checks::fullOfFences, y -> y.fence(12, true));
-        CHECKS.throwsState("the twelfth, far behind", Checks::fullOfFences, y -> y.fence(47, true));
+        CHECKS.throwsState("the twelfth", Meadows::fullOfFences, y -> y.fence(12, true));
+        CHECKS.throwsState("the twelfth, far behind", Meadows::fullOfFences, y -> y.fence(47, true));
     }
 
     private static void blocks() {
@@ -153,8 +153,8 @@ public final class TermsTest {
         }
         CHECKS.throwsIndex("without fences, block 1", FencedRows::new, y -> y.blockOf(1, 0));
         CHECKS.throwsIndex("without fences, block -1", FencedRows::new, y -> y.blockOf(-1, 0));
-        CHECKS.answers("with eleven fences, block 11", Checks::fullOfFences, y -> y.blockOf(11, 0), 11);
-        CHECKS.throwsIndex("with eleven fences, block 12", Checks::fullOfFences, y -> y.blockOf(12, 0));
+        CHECKS.answers("with eleven fences, block 11", Meadows::fullOfFences, y -> y.blockOf(11, 0), 11);
+        CHECKS.throwsIndex("with eleven fences, block 12", Meadows::fullOfFences, y -> y.blockOf(12, 0));
     }
 
     private static FencedRows heavy() {
@@ -204,7 +204,7 @@ public final class TermsTest {
     private static void fieldAndLie() {
         int[] due = {-2, -1, 0, 1, 2};
         for (int lie = -2; lie <= 2; lie++) {
-            FencedRows x = Checks.front(5, 7);
+            FencedRows x = Meadows.front(5, 7);
             x.lie(0, lie);
             x.tell();
             CHECKS.is("all there, lie " + lie, x.blockOf(0, 5), 12 + lie);
@@ -219,7 +219,7 @@ public final class TermsTest {
     }
 
     private static void lies() {
-        FencedRows x = Checks.fullOfFences();
+        FencedRows x = Meadows.fullOfFences();
         for (int k = 0; k < 12; k++) {
             CHECKS.is("the first lie of block " + k, x.blockOf(k, 4), 0);
         }
@@ -227,8 +227,8 @@ public final class TermsTest {
             x.lie(11, lie);
             CHECKS.is("lie " + lie, x.blockOf(11, 4), lie);
         }
-        CHECKS.throwsArgument("lie -3", Checks::lived, y -> y.lie(0, -3));
-        CHECKS.throwsArgument("lie 3", Checks::lived, y -> y.lie(0, 3));
+        CHECKS.throwsArgument("lie -3", Meadows::lived, y -> y.lie(0, -3));
+        CHECKS.throwsArgument("lie 3", Meadows::lived, y -> y.lie(0, 3));
     }
 
     /** The fence at 24, and lies on both sides of it. */
@@ -267,11 +267,11 @@ public final class TermsTest {
         CHECKS.is("none comes or goes: lie 0", same.blockOf(0, 4), 2);
         CHECKS.is("none comes or goes: lie 1", same.blockOf(1, 4), -1);
         CHECKS.is("none comes or goes: sum 1", same.blockOf(1, 5), 23);
-        FencedRows full = Checks.fullOfFences();
+        FencedRows full = Meadows.fullOfFences();
         full.lie(11, 2);
         full.tell();
         CHECKS.throwsState("one that can't come", () -> {
-            FencedRows x = Checks.fullOfFences();
+            FencedRows x = Meadows.fullOfFences();
             x.lie(11, 2);
             x.tell();
             return x;
@@ -289,7 +289,7 @@ public final class TermsTest {
         CHECKS.is("not trusted, a search without sums", x.seek(0), 1);
         x.trust(1);
         CHECKS.is("set to 1", x.about(9), 1);
-        CHECKS.throwsArgument("2", Checks::lived, y -> y.trust(2));
-        CHECKS.throwsArgument("-1", Checks::lived, y -> y.trust(-1));
+        CHECKS.throwsArgument("2", Meadows::lived, y -> y.trust(2));
+        CHECKS.throwsArgument("-1", Meadows::lived, y -> y.trust(-1));
     }
 }

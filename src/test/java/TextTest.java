@@ -66,16 +66,16 @@ public final class TextTest {
     }
 
     private static int error(String text) {
-        return Checks.typed(text).errorPosition();
+        return Meadows.typed(text).errorPosition();
     }
 
     private static int leftOut(String text) {
-        return Checks.typed(text).load();
+        return Meadows.typed(text).load();
     }
 
     /** M, and then as many characters as there are left. */
     private static FencedRows full() {
-        return Checks.typed("M" + "n".repeat(119));
+        return Meadows.typed("M" + "n".repeat(119));
     }
 
     // ---- TEXT
@@ -128,40 +128,40 @@ public final class TextTest {
     }
 
     private static void textAway() {
-        CHECKS.is("a00", Checks.loaded("Ma00").rowOf(0, 1), 1);
-        CHECKS.is("a47", Checks.loaded("Ma47").rowOf(47, 1), 1);
-        CHECKS.is("a09", Checks.loaded("Ma09").rowOf(9, 1), 1);
-        CHECKS.is("the others", Checks.loaded("Ma00a47a09").about(1), 3);
+        CHECKS.is("a00", Meadows.loaded("Ma00").rowOf(0, 1), 1);
+        CHECKS.is("a47", Meadows.loaded("Ma47").rowOf(47, 1), 1);
+        CHECKS.is("a09", Meadows.loaded("Ma09").rowOf(9, 1), 1);
+        CHECKS.is("the others", Meadows.loaded("Ma00a47a09").about(1), 3);
     }
 
     private static void textComesBack() {
-        CHECKS.is("c47", Checks.loaded("Ma47a46c47").rowOf(47, 1), 0);
-        CHECKS.is("c00", Checks.loaded("Ma00a46c00").rowOf(0, 1), 0);
-        CHECKS.is("the other", Checks.loaded("Ma00a46c00").about(1), 1);
+        CHECKS.is("c47", Meadows.loaded("Ma47a46c47").rowOf(47, 1), 0);
+        CHECKS.is("c00", Meadows.loaded("Ma00a46c00").rowOf(0, 1), 0);
+        CHECKS.is("the other", Meadows.loaded("Ma00a46c00").about(1), 1);
         CHECKS.is("one that is there", leftOut("Mc05"), 0);
     }
 
     private static void textWeights() {
         twoDigits("Mw20", "", 1, 99);
-        CHECKS.is("w0001", Checks.loaded("Mw0002w0001").rowOf(0, 0), 1);
-        CHECKS.is("w4799", Checks.loaded("Mw4799").rowOf(47, 0), 99);
-        CHECKS.is("w0530", Checks.loaded("Mw0530").rowOf(5, 0), 30);
+        CHECKS.is("w0001", Meadows.loaded("Mw0002w0001").rowOf(0, 0), 1);
+        CHECKS.is("w4799", Meadows.loaded("Mw4799").rowOf(47, 0), 99);
+        CHECKS.is("w0530", Meadows.loaded("Mw0530").rowOf(5, 0), 30);
     }
 
     private static void textFences() {
         twoDigits("Mf", "", 1, 47);
-        CHECKS.is("f01", Checks.loaded("Mf01").blockOf(1, 0), 1);
-        CHECKS.is("f47", Checks.loaded("Mf47").blockOf(1, 0), 47);
-        CHECKS.is("both", Checks.loaded("Mf47f01").about(0), 3);
-        CHECKS.is("one that stands keeps sums", Checks.loaded("Mf01nf01").about(4), 1);
+        CHECKS.is("f01", Meadows.loaded("Mf01").blockOf(1, 0), 1);
+        CHECKS.is("f47", Meadows.loaded("Mf47").blockOf(1, 0), 47);
+        CHECKS.is("both", Meadows.loaded("Mf47f01").about(0), 3);
+        CHECKS.is("one that stands keeps sums", Meadows.loaded("Mf01nf01").about(4), 1);
     }
 
     private static void textLies() {
         twoDigits("Ml", "0", 0, 11);
         oneDigit("Ml00", 4);
         for (int digit = 0; digit <= 4; digit++) {
-            CHECKS.is("l00" + digit, Checks.loaded("Ml00" + digit).blockOf(0, 4), digit - 2);
-            CHECKS.is("l11" + digit, Checks.loaded("Ms11l11" + digit).blockOf(11, 4), digit - 2);
+            CHECKS.is("l00" + digit, Meadows.loaded("Ml00" + digit).blockOf(0, 4), digit - 2);
+            CHECKS.is("l11" + digit, Meadows.loaded("Ms11l11" + digit).blockOf(11, 4), digit - 2);
         }
     }
 
@@ -169,39 +169,39 @@ public final class TextTest {
         twoDigits("Ms", "", 1, 11);
         for (int n = 1; n <= 11; n++) {
             int most = (48 + n) / (n + 1);
-            FencedRows x = Checks.loaded("Ms" + n / 10 + n % 10);
+            FencedRows x = Meadows.loaded("Ms" + n / 10 + n % 10);
             CHECKS.is("blocks of s " + n, x.about(0), (48 + most - 1) / most);
             CHECKS.is("the second block of s " + n, x.blockOf(1, 0), most);
         }
-        CHECKS.is("s takes sums", Checks.loaded("Ms01ns01").about(4), 0);
+        CHECKS.is("s takes sums", Meadows.loaded("Ms01ns01").about(4), 0);
     }
 
     private static void textTells() {
-        CHECKS.is("without n", Checks.loaded("M").about(4), 0);
-        CHECKS.is("with n", Checks.loaded("Mn").about(4), 1);
-        CHECKS.is("by who is away there", Checks.loaded("Ma03na04").blockOf(0, 5), 47);
-        CHECKS.is("and by the lie there", Checks.loaded("Ml000nl004").blockOf(0, 5), 46);
+        CHECKS.is("without n", Meadows.loaded("M").about(4), 0);
+        CHECKS.is("with n", Meadows.loaded("Mn").about(4), 1);
+        CHECKS.is("by who is away there", Meadows.loaded("Ma03na04").blockOf(0, 5), 47);
+        CHECKS.is("and by the lie there", Meadows.loaded("Ml000nl004").blockOf(0, 5), 46);
     }
 
     private static void textSeeks() {
         oneDigit("Mk", 2);
         String uneven = "Mf04w0309a03n";
-        CHECKS.is("looks of k0", Checks.loaded(uneven + "k0").about(5), 2);
-        CHECKS.is("looks of k1", Checks.loaded(uneven + "k1").about(5), 1);
-        CHECKS.is("looks of k2, without losses", Checks.loaded(uneven + "k2").about(5), 2);
-        CHECKS.is("looks of k2, with losses", Checks.loaded(uneven + "k1k1k2").about(5), 1 + 1 + 1);
+        CHECKS.is("looks of k0", Meadows.loaded(uneven + "k0").about(5), 2);
+        CHECKS.is("looks of k1", Meadows.loaded(uneven + "k1").about(5), 1);
+        CHECKS.is("looks of k2, without losses", Meadows.loaded(uneven + "k2").about(5), 2);
+        CHECKS.is("looks of k2, with losses", Meadows.loaded(uneven + "k1k1k2").about(5), 1 + 1 + 1);
     }
 
     private static void textLeavesOut() {
         CHECKS.is("searches without sums", leftOut("Mk0k1k2"), 3);
         CHECKS.is("a lie of a block that is not there", leftOut("Ml010"), 1);
         CHECKS.is("the twelfth fence", leftOut("Mf01f02f03f04f05f06f07f08f09f10f11f12"), 1);
-        FencedRows x = Checks.loaded("Mf01f02f03f04f05f06f07f08f09f10f11f12f47a02");
+        FencedRows x = Meadows.loaded("Mf01f02f03f04f05f06f07f08f09f10f11f12f47a02");
         CHECKS.is("the fences ahead of it", x.about(0), 12);
         CHECKS.is("the last block", x.blockOf(11, 0), 11);
         CHECKS.is("the command behind it", x.about(1), 1);
-        CHECKS.is("a search without sums is none", Checks.loaded("Ma01k0").about(6), 0);
-        CHECKS.is("a lie of no block is none", Checks.loaded("Ml010").blockOf(0, 4), 0);
+        CHECKS.is("a search without sums is none", Meadows.loaded("Ma01k0").about(6), 0);
+        CHECKS.is("a lie of no block is none", Meadows.loaded("Ml010").blockOf(0, 4), 0);
     }
 
     private static void textBlanks() {
@@ -216,9 +216,9 @@ public final class TextTest {
     }
 
     private static void textFromLeftToRight() {
-        CHECKS.is("the later weight", Checks.loaded("Mw0007w0009").rowOf(0, 0), 9);
-        CHECKS.is("a and c", Checks.loaded("Ma05c05").about(1), 0);
-        CHECKS.is("c and a", Checks.loaded("Mc05a05").about(1), 1);
+        CHECKS.is("the later weight", Meadows.loaded("Mw0007w0009").rowOf(0, 0), 9);
+        CHECKS.is("a and c", Meadows.loaded("Ma05c05").about(1), 0);
+        CHECKS.is("c and a", Meadows.loaded("Mc05a05").about(1), 1);
         CHECKS.is("a lie ahead of its fence", leftOut("Ml010f20"), 1);
         CHECKS.is("a lie behind its fence", leftOut("Mf20l010"), 0);
         CHECKS.is("of two errors the first", error("Mxy"), 1);
@@ -229,7 +229,7 @@ public final class TextTest {
             FencedRows x = new FencedRows();
             x.append(c);
             CHECKS.is("code " + c + " alone", x.errorPosition(), c == 'M' ? NONE : 0);
-            FencedRows y = Checks.typed("M");
+            FencedRows y = Meadows.typed("M");
             y.append(c);
             boolean letter = "acwflsk".indexOf(c) >= 0;
             CHECKS.is("code " + c + " behind M", y.errorPosition(), c == 'n' ? NONE : letter ? 2 : 1);
@@ -264,8 +264,8 @@ public final class TextTest {
 
     private static void textEndsTooSoon() {
         CHECKS.is("ahead of M", error(""), 0);
-        for (String cut : new String[] {"Ma", "Ma0", "Mc", "Mc4", "Mw", "Mw4", "Mw47", "Mw479", "Mf", "Mf4", "Ml", "Ml1",
-                "Ml11", "Ms", "Ms1", "Mk", "Mna", "Ma01w"}) {
+        for (String cut : new String[] {"Ma", "Ma0", "Mc", "Mc4", "Mw", "Mw4", "Mw47", "Mw479", "Mf", "Mf4", "Ml",
+                "Ml1", "Ml11", "Ms", "Ms1", "Mk", "Mna", "Ma01w"}) {
             CHECKS.is(cut, error(cut), cut.length());
         }
         CHECKS.is("with 120 characters", error("M" + "n".repeat(118) + "k"), 120);
@@ -291,8 +291,8 @@ public final class TextTest {
         CHECKS.is("code 0", x.append(0), 1);
         CHECKS.is("code 255", x.append(255), 2);
         CHECKS.is("code 128", x.append(128), 3);
-        CHECKS.throwsArgument("code -1", () -> Checks.typed("Mn"), y -> y.append(-1));
-        CHECKS.throwsArgument("code 256", () -> Checks.typed("Mn"), y -> y.append(256));
+        CHECKS.throwsArgument("code -1", () -> Meadows.typed("Mn"), y -> y.append(-1));
+        CHECKS.throwsArgument("code 256", () -> Meadows.typed("Mn"), y -> y.append(256));
     }
 
     private static void promise2Lengths() {
@@ -305,15 +305,15 @@ public final class TextTest {
     }
 
     private static void promise2OutOfRange() {
-        for (int wrong : new int[] {-1, 256, Integer.MIN_VALUE, Integer.MAX_VALUE, 256 + 'n', -256 + 'n', 65536 + 'n'}) {
-            CHECKS.throwsArgument("append(" + wrong + ")", () -> Checks.typed("Mn"), x -> x.append(wrong));
+        for (int wrong : new int[] {-1, 256, Integer.MIN_VALUE, Integer.MAX_VALUE, 256 + 'n', 'n' - 256, 65536 + 'n'}) {
+            CHECKS.throwsArgument("append(" + wrong + ")", () -> Meadows.typed("Mn"), x -> x.append(wrong));
         }
         CHECKS.throwsArgument("append(256) to a full text", TextTest::full, x -> x.append(256));
         CHECKS.throwsArgument("append(-1) to a full text", TextTest::full, x -> x.append(-1));
     }
 
     private static void promise2Full() {
-        CHECKS.answers("the last place", () -> Checks.typed("M" + "n".repeat(118)), x -> x.append('n'), 120);
+        CHECKS.answers("the last place", () -> Meadows.typed("M" + "n".repeat(118)), x -> x.append('n'), 120);
         CHECKS.throwsState("none is left", TextTest::full, x -> x.append('n'));
         CHECKS.throwsState("none is left for code 0", TextTest::full, x -> x.append(0));
         CHECKS.throwsState("none is left for code 255", TextTest::full, x -> x.append(255));
@@ -327,10 +327,10 @@ public final class TextTest {
     }
 
     private static void promise3Empties() {
-        FencedRows x = Checks.typed("Mnn");
+        FencedRows x = Meadows.typed("Mnn");
         x.clearText();
         CHECKS.is("it is no meadow", x.errorPosition(), 0);
-        Checks.type(x, "M");
+        Meadows.type(x, "M");
         CHECKS.is("nothing old stands behind the new", x.errorPosition(), NONE);
         CHECKS.is("nothing old is done", x.load() + x.about(4), 0);
         CHECKS.answers("what is empty stays so", FencedRows::new, y -> y.clearText() + y.errorPosition(), 0);
@@ -338,9 +338,9 @@ public final class TextTest {
 
     private static void promise3Lengths() {
         CHECKS.answers("of a new object", FencedRows::new, FencedRows::clearText, 0);
-        CHECKS.answers("of three characters", () -> Checks.typed("Mnn"), FencedRows::clearText, 3);
+        CHECKS.answers("of three characters", () -> Meadows.typed("Mnn"), FencedRows::clearText, 3);
         CHECKS.answers("of 120", TextTest::full, FencedRows::clearText, 120);
-        FencedRows x = Checks.typed("Mn");
+        FencedRows x = Meadows.typed("Mn");
         x.clearText();
         CHECKS.is("a second time", x.clearText(), 0);
     }
@@ -348,10 +348,10 @@ public final class TextTest {
     // ---- promises 4 and 5
 
     private static void promise4Keeps() {
-        CHECKS.keeps("a meadow", Checks::lived, FencedRows::errorPosition);
-        CHECKS.keeps("no meadow", () -> Checks.typed("Ma4x"), FencedRows::errorPosition);
+        CHECKS.keeps("a meadow", Meadows::lived, FencedRows::errorPosition);
+        CHECKS.keeps("no meadow", () -> Meadows.typed("Ma4x"), FencedRows::errorPosition);
         CHECKS.keeps("no text", FencedRows::new, FencedRows::errorPosition);
-        FencedRows x = Checks.typed("Mna01k0");
+        FencedRows x = Meadows.typed("Mna01k0");
         x.errorPosition();
         CHECKS.is("no command is done", x.about(4) + x.about(1), 0);
         CHECKS.is("the same again", x.errorPosition(), NONE);
@@ -366,19 +366,19 @@ public final class TextTest {
     }
 
     private static void promise5FromNew() {
-        FencedRows x = Checks.lived();
+        FencedRows x = Meadows.lived();
         x.clearText();
         x.append('M');
         CHECKS.is("load of M", x.load(), 0);
         CHECKS.same("the state", Checks.seen(x), Checks.seen(new FencedRows()));
-        FencedRows y = Checks.lived();
+        FencedRows y = Meadows.lived();
         y.load();
-        CHECKS.same("the state of the text", Checks.seen(y), Checks.seen(Checks.loaded("Mw0507a06s02n")));
+        CHECKS.same("the state of the text", Checks.seen(y), Checks.seen(Meadows.loaded("Mw0507a06s02n")));
         CHECKS.is("setting 0", y.about(9), 1);
     }
 
     private static void promise5Commands() {
-        FencedRows x = Checks.typed("Mw0599a03a47c47f10f20l012l104l000n");
+        FencedRows x = Meadows.typed("Mw0599a03a47c47f10f20l012l104l000n");
         CHECKS.is("nothing but a lie is left out", x.load(), 1);
         FencedRows due = new FencedRows();
         due.weigh(5, 99);
@@ -388,7 +388,7 @@ public final class TextTest {
         due.lie(0, -2);
         due.tell();
         CHECKS.same("the same by calls", Checks.seen(x), Checks.seen(due));
-        FencedRows y = Checks.loaded("Ms03a05a40nk0c05k1k2");
+        FencedRows y = Meadows.loaded("Ms03a05a40nk0c05k1k2");
         FencedRows same = new FencedRows();
         same.spread(3);
         same.away(5, true);
@@ -402,7 +402,7 @@ public final class TextTest {
     }
 
     private static void promise5Forgets() {
-        FencedRows x = Checks.lived();
+        FencedRows x = Meadows.lived();
         x.load();
         CHECKS.same("undo", Checks.thrown(x, FencedRows::undo), IllegalStateException.class.getName());
         CHECKS.same("slot 0", Checks.thrown(x, y -> y.restore(0)), IllegalStateException.class.getName());
@@ -415,13 +415,13 @@ public final class TextTest {
     }
 
     private static void promise5KeepsTheText() {
-        FencedRows x = Checks.typed("Ma01");
+        FencedRows x = Meadows.typed("Ma01");
         x.load();
         CHECKS.is("its length", x.append('n'), 5);
         x.load();
         CHECKS.is("both commands", x.about(1) + x.about(4), 2);
-        CHECKS.throwsState("no meadow", () -> Checks.typed("Ma01x"), FencedRows::load);
-        FencedRows y = Checks.typed("Ma0");
+        CHECKS.throwsState("no meadow", () -> Meadows.typed("Ma01x"), FencedRows::load);
+        FencedRows y = Meadows.typed("Ma0");
         CHECKS.same("too short", Checks.thrown(y, FencedRows::load), IllegalStateException.class.getName());
         CHECKS.is("its length then", y.append('7'), 4);
         y.load();
@@ -431,35 +431,35 @@ public final class TextTest {
     private static void promise5LeftOut() {
         CHECKS.is("no command", leftOut("M"), 0);
         CHECKS.is("none of some", leftOut("Ma01nk0"), 0);
-        for (String done : new String[] {"a00", "c47", "w0001", "f47", "l004", "s01", "s11", "n", "nk0", "nk1", "nk2"}) {
+        for (String done : new String[] {"a00", "c47", "w0001", "f47", "l004", "s01", "s11", "n", "nk0", "nk2"}) {
             CHECKS.is("not " + done, leftOut("M" + done), 0);
         }
         CHECKS.is("also what changes nothing is done", leftOut("Mc01w0101"), 0);
         CHECKS.is("some", leftOut("Mk0a01k1nk2l010"), 3);
         CHECKS.is("all", leftOut("Mk0l010"), 2);
         CHECKS.is("all of 59", leftOut("M" + "k0".repeat(59)), 59);
-        FencedRows x = Checks.typed("Mk0");
+        FencedRows x = Meadows.typed("Mk0");
         x.load();
         CHECKS.is("again", x.load(), 1);
     }
 
     private static void promise5NoMeadow() {
-        FencedRows lived = Checks.lived();
+        FencedRows lived = Meadows.lived();
         CHECKS.is("the text of a meadow that has lived", lived.errorPosition(), NONE);
         CHECKS.throwsState("no text", TextTest::livedWithoutText, FencedRows::load);
         for (String wrong : new String[] {"x", "Mx", "Ma0", "Mk3", "nM", "Mn ", "Mf00", "Mw0000"}) {
             CHECKS.throwsState(wrong, () -> {
                 FencedRows x = livedWithoutText();
-                Checks.type(x, wrong);
+                Meadows.type(x, wrong);
                 return x;
             }, FencedRows::load);
         }
-        CHECKS.throwsState("120 characters, the last too much", () -> Checks.typed("M" + "n".repeat(118) + "a"),
+        CHECKS.throwsState("120 characters, the last too much", () -> Meadows.typed("M" + "n".repeat(118) + "a"),
                 FencedRows::load);
     }
 
     private static FencedRows livedWithoutText() {
-        FencedRows x = Checks.lived();
+        FencedRows x = Meadows.lived();
         x.clearText();
         return x;
     }

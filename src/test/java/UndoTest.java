@@ -52,7 +52,7 @@ public final class UndoTest {
 
     /** A meadow with four states remembered: those ahead of a fence, two weights, and a row that went away. */
     private static FencedRows some() {
-        FencedRows x = Checks.front(3, 5);
+        FencedRows x = Meadows.front(3, 5);
         x.away(1, true);
         return x;
     }
@@ -61,10 +61,10 @@ public final class UndoTest {
 
     /** That undo leads back to all that there was. */
     private static void undone(String what, Checks.Use action) {
-        FencedRows x = Checks.lived();
+        FencedRows x = Meadows.lived();
         action.on(x);
         x.undo();
-        CHECKS.same(what, Checks.seen(x), Checks.seen(Checks.lived()));
+        CHECKS.same(what, Checks.seen(x), Checks.seen(Meadows.lived()));
     }
 
     private static void undoEverything() {
@@ -128,7 +128,7 @@ public final class UndoTest {
         CHECKS.throwsArgument("weigh 0", UndoTest::some, x -> x.weigh(0, 0));
         CHECKS.throwsIndex("away", UndoTest::some, x -> x.away(48, true));
         CHECKS.throwsIndex("fence", UndoTest::some, x -> x.fence(0, true));
-        CHECKS.throwsState("the twelfth fence", Checks::fullOfFences, x -> x.fence(20, true));
+        CHECKS.throwsState("the twelfth fence", Meadows::fullOfFences, x -> x.fence(20, true));
         CHECKS.throwsArgument("spread", UndoTest::some, x -> x.spread(0));
         CHECKS.throwsIndex("lie", UndoTest::some, x -> x.lie(2, 0));
         CHECKS.throwsArgument("lie 3", UndoTest::some, x -> x.lie(0, 3));
@@ -203,7 +203,7 @@ public final class UndoTest {
     }
 
     private static void undoLoadAndRestore() {
-        FencedRows loaded = Checks.loaded("Ma01a02nk0");
+        FencedRows loaded = Meadows.loaded("Ma01a02nk0");
         CHECKS.same("behind load", Checks.thrown(loaded, FencedRows::undo), STATE);
         FencedRows x = some();
         x.save(0);
@@ -215,40 +215,40 @@ public final class UndoTest {
 
     private static void faceNone() {
         CHECKS.is("NONE", FencedRows.NONE, -1);
-        CHECKS.answers("a meadow", () -> Checks.typed("M"), FencedRows::errorPosition, FencedRows.NONE);
+        CHECKS.answers("a meadow", () -> Meadows.typed("M"), FencedRows::errorPosition, FencedRows.NONE);
         CHECKS.answers("no best way", FencedRows::new, FencedRows::bestWay, FencedRows.NONE);
         CHECKS.answers("no block is doubted", FencedRows::new, FencedRows::farthest, FencedRows.NONE);
         CHECKS.answers("no command fails", FencedRows::new, x -> x.runScript(1, 40000L), FencedRows.NONE);
     }
 
     private static void faceText() {
-        FencedRows x = Checks.lived();
+        FencedRows x = Meadows.lived();
         x.append('x');
         x.errorPosition();
         x.clearText();
-        CHECKS.same("the state", Checks.seen(x), Checks.seen(Checks.lived()));
+        CHECKS.same("the state", Checks.seen(x), Checks.seen(Meadows.lived()));
         CHECKS.is("no action", x.undo(), 11);
         CHECKS.is("slot 0", x.restore(0) + x.about(9), 3 + 1);
-        CHECKS.throwsNothing("load", () -> Checks.typed("M"), FencedRows::load);
+        CHECKS.throwsNothing("load", () -> Meadows.typed("M"), FencedRows::load);
     }
 
     private static void faceWhatThereIs() {
         for (int what = 0; what <= 10; what++) {
             int w = what;
-            CHECKS.keeps("about(" + what + ")", Checks::lived, x -> x.about(w));
+            CHECKS.keeps("about(" + what + ")", Meadows::lived, x -> x.about(w));
         }
         for (int what = 0; what <= 4; what++) {
             int w = what;
-            CHECKS.keeps("rowOf(1, " + what + ")", Checks::lived, x -> x.rowOf(1, w));
+            CHECKS.keeps("rowOf(1, " + what + ")", Meadows::lived, x -> x.rowOf(1, w));
         }
         for (int what = 0; what <= 5; what++) {
             int w = what;
-            CHECKS.keeps("blockOf(1, " + what + ")", Checks::lived, x -> x.blockOf(1, w));
+            CHECKS.keeps("blockOf(1, " + what + ")", Meadows::lived, x -> x.blockOf(1, w));
         }
-        CHECKS.answers("the text behind about", Checks::lived, x -> x.about(0) * 0 + x.clearText(), 13);
-        CHECKS.answers("the text behind rowOf", Checks::lived, x -> x.rowOf(0, 0) * 0 + x.clearText(), 13);
-        CHECKS.answers("the text behind blockOf", Checks::lived, x -> x.blockOf(0, 0) * 0 + x.clearText(), 13);
-        FencedRows x = Checks.lived();
+        CHECKS.answers("the text behind about", Meadows::lived, x -> x.about(0) * 0 + x.clearText(), 13);
+        CHECKS.answers("the text behind rowOf", Meadows::lived, x -> x.rowOf(0, 0) * 0 + x.clearText(), 13);
+        CHECKS.answers("the text behind blockOf", Meadows::lived, x -> x.blockOf(0, 0) * 0 + x.clearText(), 13);
+        FencedRows x = Meadows.lived();
         CHECKS.is("row 3 was taken wrongly", x.about(7), 1);
         CHECKS.is("row 35 was missed", x.about(8), 1);
         CHECKS.is("block 0 lies", x.blockOf(0, 4), -1);
@@ -258,25 +258,25 @@ public final class UndoTest {
     private static void faceChangeNothing() {
         for (int way = 0; way <= 2; way++) {
             int w = way;
-            CHECKS.keeps("ifSought by " + way, Checks::lived, x -> x.ifSought(w, 1));
-            CHECKS.keeps("looks by " + way, Checks::lived, x -> x.looks(0, w, 1));
+            CHECKS.keeps("ifSought by " + way, Meadows::lived, x -> x.ifSought(w, 1));
+            CHECKS.keeps("looks by " + way, Meadows::lived, x -> x.looks(0, w, 1));
         }
-        CHECKS.keeps("bestWay", Checks::lived, FencedRows::bestWay);
-        CHECKS.keeps("leastLooks", Checks::lived, x -> x.leastLooks(2));
-        CHECKS.keeps("balanced", Checks::lived, x -> x.balanced(3));
-        CHECKS.keeps("canBe", Checks::lived, x -> x.canBe(1));
-        CHECKS.keeps("farthest", Checks::lived, FencedRows::farthest);
-        CHECKS.keeps("runScript", Checks::lived, x -> x.runScript(3, 101014000050002L));
-        CHECKS.keeps("simulate", Checks::lived, x -> x.simulate(3L, 60));
+        CHECKS.keeps("bestWay", Meadows::lived, FencedRows::bestWay);
+        CHECKS.keeps("leastLooks", Meadows::lived, x -> x.leastLooks(2));
+        CHECKS.keeps("balanced", Meadows::lived, x -> x.balanced(3));
+        CHECKS.keeps("canBe", Meadows::lived, x -> x.canBe(1));
+        CHECKS.keeps("farthest", Meadows::lived, FencedRows::farthest);
+        CHECKS.keeps("runScript", Meadows::lived, x -> x.runScript(3, 101014000050002L));
+        CHECKS.keeps("simulate", Meadows::lived, x -> x.simulate(3L, 60));
     }
 
     private static void faceScripts() {
         for (int group : new int[] {10001, 20201, 30004, 40000, 50001, 60000, 70001, 80001, 90000}) {
-            CHECKS.keeps("runScript of " + group, Checks::lived, x -> x.runScript(1, group));
+            CHECKS.keeps("runScript of " + group, Meadows::lived, x -> x.runScript(1, group));
         }
         for (long seed = 0; seed < 10; seed++) {
             long s = seed;
-            CHECKS.keeps("simulate by " + seed, Checks::lived, x -> x.simulate(s, 40));
+            CHECKS.keeps("simulate by " + seed, Meadows::lived, x -> x.simulate(s, 40));
         }
     }
 
@@ -316,9 +316,9 @@ public final class UndoTest {
 
     private static void promise17None() {
         CHECKS.throwsState("of a new object", FencedRows::new, FencedRows::undo);
-        CHECKS.throwsState("behind load", () -> Checks.loaded("Ma01"), FencedRows::undo);
+        CHECKS.throwsState("behind load", () -> Meadows.loaded("Ma01"), FencedRows::undo);
         CHECKS.throwsState("behind restore", () -> {
-            FencedRows x = Checks.lived();
+            FencedRows x = Meadows.lived();
             x.restore(0);
             return x;
         }, FencedRows::undo);

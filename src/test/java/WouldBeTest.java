@@ -85,7 +85,7 @@ public final class WouldBeTest {
 
     /** Of the first four rows one would be taken wrongly by a lie; two rows behind them went away since the telling. */
     private static FencedRows mistaken() {
-        FencedRows x = Checks.front(1, 1, 1, 1);
+        FencedRows x = Meadows.front(1, 1, 1, 1);
         x.lie(0, -1);
         x.tell();
         x.away(20, true);
@@ -93,27 +93,11 @@ public final class WouldBeTest {
         return x;
     }
 
-    /** Four rows that weigh 1, 1, 1 and 9, of which the last is away and told. */
-    private static FencedRows uneven() {
-        FencedRows x = Checks.front(1, 1, 1, 9);
-        x.away(3, true);
-        x.tell();
-        return x;
-    }
-
-    private static FencedRows allAway() {
-        FencedRows x = new FencedRows();
-        for (int r = 0; r < 48; r++) {
-            x.away(r, true);
-        }
-        return x;
-    }
-
     private static void promise18ChangesNothing() {
         for (int what = 0; what <= 3; what++) {
             int w = what;
             CHECKS.keeps("ifSought(0, " + what + ")", WouldBeTest::mistaken, x -> x.ifSought(0, w));
-            CHECKS.keeps("untrusted ifSought(2, " + what + ")", Checks::lived, x -> x.ifSought(2, w));
+            CHECKS.keeps("untrusted ifSought(2, " + what + ")", Meadows::lived, x -> x.ifSought(2, w));
         }
     }
 
@@ -121,9 +105,9 @@ public final class WouldBeTest {
         int[] due = {2, 1, 2};
         for (int way = 0; way <= 2; way++) {
             int w = way;
-            CHECKS.answers("way " + way, WouldBeTest::uneven, x -> x.ifSought(w, 0), due[way]);
+            CHECKS.answers("way " + way, Meadows::uneven, x -> x.ifSought(w, 0), due[way]);
         }
-        FencedRows x = uneven();
+        FencedRows x = Meadows.uneven();
         x.seek(0);
         x.seek(0);
         CHECKS.is("way 2 with losses", x.ifSought(2, 0), 1);
@@ -135,7 +119,7 @@ public final class WouldBeTest {
         FencedRows x = new FencedRows();
         x.tell();
         CHECKS.is("none", x.ifSought(0, 0), 0);
-        FencedRows y = uneven();
+        FencedRows y = Meadows.uneven();
         y.seek(0);
         CHECKS.is("not those so far", y.ifSought(0, 0), 2);
     }
@@ -143,15 +127,15 @@ public final class WouldBeTest {
     private static void promise18Taken() {
         CHECKS.answers("of a lie", WouldBeTest::mistaken, x -> x.ifSought(0, 1), 1);
         CHECKS.answers("untrusted", WouldBeTest::mistaken, x -> x.trust(0) * 0 + x.ifSought(0, 1), 2);
-        CHECKS.answers("all", WouldBeTest::allAway, x -> x.tell() + x.ifSought(0, 1), 48);
+        CHECKS.answers("all", Meadows::allAway, x -> x.tell() + x.ifSought(0, 1), 48);
         CHECKS.answers("none", FencedRows::new, x -> x.tell() * 0 + x.ifSought(0, 1), 0);
     }
 
     private static void promise18Wrong() {
         CHECKS.answers("of a lie", WouldBeTest::mistaken, x -> x.ifSought(0, 2), 1);
         CHECKS.answers("untrusted", WouldBeTest::mistaken, x -> x.trust(0) * 0 + x.ifSought(0, 2), 0);
-        CHECKS.answers("all of them were away", WouldBeTest::allAway, x -> x.tell() + x.ifSought(0, 2), 0);
-        FencedRows x = allAway();
+        CHECKS.answers("all of them were away", Meadows::allAway, x -> x.tell() + x.ifSought(0, 2), 0);
+        FencedRows x = Meadows.allAway();
         x.tell();
         for (int r = 0; r < 48; r++) {
             x.away(r, false);
@@ -172,7 +156,7 @@ public final class WouldBeTest {
 
     private static void promise18AsSeek() {
         for (int way = 0; way <= 2; way++) {
-            for (Checks.Maker maker : List.<Checks.Maker>of(WouldBeTest::mistaken, WouldBeTest::uneven, Checks::lived,
+            for (Checks.Maker maker : List.<Checks.Maker>of(WouldBeTest::mistaken, Meadows::uneven, Meadows::lived,
                     Turns::meadow)) {
                 FencedRows x = maker.made();
                 int[] due = {x.ifSought(way, 0), x.ifSought(way, 1), x.ifSought(way, 2), x.ifSought(way, 3)};
@@ -190,13 +174,13 @@ public final class WouldBeTest {
 
     private static void promise18OutOfRange() {
         for (int way : NO_WAYS) {
-            CHECKS.throwsArgument("way " + way, WouldBeTest::uneven, x -> x.ifSought(way, 0));
-            CHECKS.throwsArgument("way " + way + ", untrusted", Checks::lived, x -> x.ifSought(way, 3));
+            CHECKS.throwsArgument("way " + way, Meadows::uneven, x -> x.ifSought(way, 0));
+            CHECKS.throwsArgument("way " + way + ", untrusted", Meadows::lived, x -> x.ifSought(way, 3));
             CHECKS.throwsArgument("way " + way + ", and no sums", FencedRows::new, x -> x.ifSought(way, 0));
         }
         for (int what : new int[] {-1, 4, LEAST, GREATEST}) {
-            CHECKS.throwsArgument("number " + what, WouldBeTest::uneven, x -> x.ifSought(0, what));
-            CHECKS.throwsArgument("number " + what + ", untrusted", Checks::lived, x -> x.ifSought(2, what));
+            CHECKS.throwsArgument("number " + what, Meadows::uneven, x -> x.ifSought(0, what));
+            CHECKS.throwsArgument("number " + what + ", untrusted", Meadows::lived, x -> x.ifSought(2, what));
             CHECKS.throwsArgument("number " + what + ", and no sums", FencedRows::new, x -> x.ifSought(0, what));
         }
     }
@@ -204,24 +188,24 @@ public final class WouldBeTest {
     private static void promise18NoSums() {
         for (int what = 0; what <= 3; what++) {
             int w = what;
-            CHECKS.throwsState("number " + what, () -> Checks.front(1, 1), x -> x.ifSought(w % 3, w));
-            CHECKS.throwsNothing("number " + what + ", untrusted", () -> Checks.front(1, 1),
+            CHECKS.throwsState("number " + what, () -> Meadows.front(1, 1), x -> x.ifSought(w % 3, w));
+            CHECKS.throwsNothing("number " + what + ", untrusted", () -> Meadows.front(1, 1),
                     x -> x.trust(0) + x.ifSought(w % 3, w));
         }
-        FencedRows x = uneven();
+        FencedRows x = Meadows.uneven();
         x.fence(20, true);
         CHECKS.same("none any more", Checks.thrown(x, y -> y.ifSought(0, 0)), IllegalStateException.class.getName());
     }
 
     private static void promise19Least() {
-        FencedRows x = uneven();
+        FencedRows x = Meadows.uneven();
         CHECKS.is("by weights, 1 look of 2, 1 and 2", x.bestWay(), 1);
         x.weigh(3, 1);
         x.tell();
         x.seek(0);
         x.seek(0);
         CHECKS.is("by losses, 1 look of 2, 2 and 1", x.bestWay(), 2);
-        FencedRows rows = Checks.front(9, 1, 1, 1);
+        FencedRows rows = Meadows.front(9, 1, 1, 1);
         rows.away(3, true);
         rows.tell();
         CHECKS.is("by rows, 2 looks of 2, 3 and 2", rows.bestWay(), 0);
@@ -229,15 +213,15 @@ public final class WouldBeTest {
 
     private static void promise19Lowest() {
         CHECKS.answers("no looks by each", FencedRows::new, x -> x.tell() * 0 + x.bestWay(), 0);
-        FencedRows x = uneven();
+        FencedRows x = Meadows.uneven();
         x.seek(0);
         x.seek(0);
         CHECKS.is("2, 1 and 1 looks", x.bestWay(), 1);
-        FencedRows alike = Checks.front(1, 1, 1, 1);
+        FencedRows alike = Meadows.front(1, 1, 1, 1);
         alike.away(3, true);
         alike.tell();
         CHECKS.is("2, 2 and 2 looks", alike.bestWay(), 0);
-        FencedRows ends = Checks.front(9, 1, 1, 1);
+        FencedRows ends = Meadows.front(9, 1, 1, 1);
         ends.away(3, true);
         ends.tell();
         ends.seek(0);
@@ -245,9 +229,9 @@ public final class WouldBeTest {
     }
 
     private static void promise19None() {
-        CHECKS.answers("no sums yet", () -> Checks.front(1, 1), FencedRows::bestWay, NONE);
-        CHECKS.answers("untrusted", () -> Checks.front(1, 1), x -> x.trust(0) * 0 + x.bestWay(), 0);
-        FencedRows x = uneven();
+        CHECKS.answers("no sums yet", () -> Meadows.front(1, 1), FencedRows::bestWay, NONE);
+        CHECKS.answers("untrusted", () -> Meadows.front(1, 1), x -> x.trust(0) * 0 + x.bestWay(), 0);
+        FencedRows x = Meadows.uneven();
         x.fence(40, true);
         CHECKS.is("no sums any more", x.bestWay(), NONE);
         x.trust(0);
@@ -262,20 +246,20 @@ public final class WouldBeTest {
             int most = 0;
             int sum = 0;
             for (int r = 0; r < weights.length; r++) {
-                FencedRows x = Checks.front(weights);
+                FencedRows x = Meadows.front(weights);
                 x.away(r, true);
                 x.tell();
                 int looks = x.seek(way);
                 most = Math.max(most, looks);
                 sum += looks;
             }
-            CHECKS.is("the most by " + way, Checks.front(weights).looks(0, way, 0), most);
-            CHECKS.is("all by " + way, Checks.front(weights).looks(0, way, 1), sum);
+            CHECKS.is("the most by " + way, Meadows.front(weights).looks(0, way, 0), most);
+            CHECKS.is("all by " + way, Meadows.front(weights).looks(0, way, 1), sum);
         }
     }
 
     private static void promise20BlockAlone() {
-        FencedRows x = Checks.front(9, 1, 1, 1);
+        FencedRows x = Meadows.front(9, 1, 1, 1);
         int due = 1 + 2 + 3 + 3;
         CHECKS.is("all there, no sums", x.looks(0, 1, 1), due);
         x.away(0, true);
@@ -290,7 +274,7 @@ public final class WouldBeTest {
     }
 
     private static void promise20Blocks() {
-        FencedRows x = Checks.front(1);
+        FencedRows x = Meadows.front(1);
         x.fence(4, true);
         x.fence(8, true);
         int[] most = {0, 2, 2, 6};
@@ -299,13 +283,13 @@ public final class WouldBeTest {
             CHECKS.is("the most of block " + k, x.looks(k, 0, 0), most[k]);
             CHECKS.is("all of block " + k, x.looks(k, 0, 1), sum[k]);
         }
-        CHECKS.answers("block 11", Checks::fullOfFences, y -> y.looks(11, 0, 0), 6);
+        CHECKS.answers("block 11", Meadows::fullOfFences, y -> y.looks(11, 0, 0), 6);
     }
 
     private static void promise20Ways() {
         int[] most = {2, 3, 3};
         int[] sum = {14, 12, 12};
-        FencedRows x = uneven();
+        FencedRows x = Meadows.uneven();
         for (int i = 0; i < 3; i++) {
             x.seek(0);
         }
@@ -316,9 +300,9 @@ public final class WouldBeTest {
     }
 
     private static void promise20Most() {
-        CHECKS.answers("of one row none", Checks::fullOfFences, x -> x.looks(0, 0, 0), 0);
-        CHECKS.answers("of two rows", () -> Checks.front(1, 1), x -> x.looks(0, 0, 0), 1);
-        CHECKS.answers("of three rows", () -> Checks.front(1, 1, 1), x -> x.looks(0, 0, 0), 2);
+        CHECKS.answers("of one row none", Meadows::fullOfFences, x -> x.looks(0, 0, 0), 0);
+        CHECKS.answers("of two rows", () -> Meadows.front(1, 1), x -> x.looks(0, 0, 0), 1);
+        CHECKS.answers("of three rows", () -> Meadows.front(1, 1, 1), x -> x.looks(0, 0, 0), 2);
         CHECKS.answers("of 48 rows", FencedRows::new, x -> x.looks(0, 0, 0), 6);
         FencedRows x = new FencedRows();
         for (int r = 0; r < 7; r++) {
@@ -332,9 +316,9 @@ public final class WouldBeTest {
     }
 
     private static void promise20Sum() {
-        CHECKS.answers("of one row none", Checks::fullOfFences, x -> x.looks(0, 0, 1), 0);
+        CHECKS.answers("of one row none", Meadows::fullOfFences, x -> x.looks(0, 0, 1), 0);
         CHECKS.answers("of 48 rows", FencedRows::new, x -> x.looks(0, 0, 1), 16 * 5 + 32 * 6);
-        FencedRows x = Checks.front(1, 1, 1);
+        FencedRows x = Meadows.front(1, 1, 1);
         x.away(2, true);
         x.tell();
         x.seek(0);
@@ -343,7 +327,7 @@ public final class WouldBeTest {
         x.seek(0);
         CHECKS.is("losses of 3", x.looks(0, 0, 1), 1 + 2 + 2 * 4);
         CHECKS.is("losses of 3 by losses", x.looks(0, 2, 1), 2 + 2 + 4);
-        FencedRows most = allAway();
+        FencedRows most = Meadows.allAway();
         most.trust(0);
         for (int i = 0; i < 100; i++) {
             most.seek(0);
@@ -353,30 +337,30 @@ public final class WouldBeTest {
 
     private static void promise20NoBlock() {
         for (int k : NO_BLOCKS) {
-            CHECKS.throwsIndex("block " + k, Checks::lived, x -> x.looks(k, 0, 0));
-            CHECKS.throwsIndex("block " + k + ", and no such way", Checks::lived, x -> x.looks(k, 3, 0));
-            CHECKS.throwsIndex("block " + k + ", and no such number", Checks::lived, x -> x.looks(k, 0, 2));
+            CHECKS.throwsIndex("block " + k, Meadows::lived, x -> x.looks(k, 0, 0));
+            CHECKS.throwsIndex("block " + k + ", and no such way", Meadows::lived, x -> x.looks(k, 3, 0));
+            CHECKS.throwsIndex("block " + k + ", and no such number", Meadows::lived, x -> x.looks(k, 0, 2));
         }
         CHECKS.throwsIndex("block 1 of one", FencedRows::new, x -> x.looks(1, 0, 0));
-        CHECKS.throwsIndex("block 12 of twelve", Checks::fullOfFences, x -> x.looks(12, 0, 0));
+        CHECKS.throwsIndex("block 12 of twelve", Meadows::fullOfFences, x -> x.looks(12, 0, 0));
     }
 
     private static void promise20OutOfRange() {
         for (int way : NO_WAYS) {
-            CHECKS.throwsArgument("way " + way, Checks::lived, x -> x.looks(0, way, 0));
+            CHECKS.throwsArgument("way " + way, Meadows::lived, x -> x.looks(0, way, 0));
         }
         for (int what : new int[] {-1, 2, LEAST, GREATEST}) {
-            CHECKS.throwsArgument("number " + what, Checks::lived, x -> x.looks(2, 0, what));
+            CHECKS.throwsArgument("number " + what, Meadows::lived, x -> x.looks(2, 0, what));
         }
     }
 
     private static void promise21Few() {
         CHECKS.answers("48 rows", FencedRows::new, x -> x.leastLooks(0), 272);
-        CHECKS.answers("three rows", () -> Checks.front(1, 1, 1), x -> x.leastLooks(0), 5);
-        CHECKS.answers("two rows", () -> Checks.front(1, 1), x -> x.leastLooks(0), 2);
-        CHECKS.answers("one row", () -> Checks.front(1), x -> x.leastLooks(0), 0);
-        CHECKS.answers("weights do not matter", () -> Checks.front(99, 1, 1), x -> x.leastLooks(0), 5);
-        FencedRows most = allAway();
+        CHECKS.answers("three rows", () -> Meadows.front(1, 1, 1), x -> x.leastLooks(0), 5);
+        CHECKS.answers("two rows", () -> Meadows.front(1, 1), x -> x.leastLooks(0), 2);
+        CHECKS.answers("one row", () -> Meadows.front(1), x -> x.leastLooks(0), 0);
+        CHECKS.answers("weights do not matter", () -> Meadows.front(99, 1, 1), x -> x.leastLooks(0), 5);
+        FencedRows most = Meadows.allAway();
         most.trust(0);
         for (int i = 0; i < 100; i++) {
             most.seek(0);
@@ -385,19 +369,19 @@ public final class WouldBeTest {
     }
 
     private static void promise21Blocks() {
-        FencedRows x = Checks.front(1);
+        FencedRows x = Meadows.front(1);
         x.fence(4, true);
         x.fence(8, true);
         int[] due = {0, 5, 8, 24 * 5 + 16 * 6};
         for (int k = 0; k < 4; k++) {
             CHECKS.is("block " + k, x.leastLooks(k), due[k]);
         }
-        CHECKS.answers("block 11", Checks::fullOfFences, y -> y.leastLooks(11), 27 * 5 + 10 * 6);
+        CHECKS.answers("block 11", Meadows::fullOfFences, y -> y.leastLooks(11), 27 * 5 + 10 * 6);
     }
 
     /** Five rows with these losses, in a block of their own. */
     private static FencedRows withLosses(int... losses) {
-        FencedRows x = Checks.front(1, 1, 1, 1, 1);
+        FencedRows x = Meadows.front(1, 1, 1, 1, 1);
         x.trust(0);
         for (int r = 0; r < losses.length; r++) {
             x.away(r, true);
@@ -443,16 +427,16 @@ public final class WouldBeTest {
 
     private static void promise21NoBlock() {
         for (int k : NO_BLOCKS) {
-            CHECKS.throwsIndex("block " + k, Checks::lived, x -> x.leastLooks(k));
+            CHECKS.throwsIndex("block " + k, Meadows::lived, x -> x.leastLooks(k));
         }
         CHECKS.throwsIndex("block 1 of one", FencedRows::new, x -> x.leastLooks(1));
-        CHECKS.throwsIndex("block 12 of twelve", Checks::fullOfFences, x -> x.leastLooks(12));
+        CHECKS.throwsIndex("block 12 of twelve", Meadows::fullOfFences, x -> x.leastLooks(12));
     }
 
     // ---- promises 22 to 24
 
     private static void promise22NotAsTheyAre() {
-        FencedRows x = Checks.fullOfFences();
+        FencedRows x = Meadows.fullOfFences();
         x.away(0, true);
         CHECKS.is("who is away and where fences are does not matter", x.balanced(1), 24);
         CHECKS.is("nothing is changed", x.about(0), 12);
@@ -498,12 +482,12 @@ public final class WouldBeTest {
 
     private static void promise22Throws() {
         for (int n : new int[] {0, 12, -1, LEAST, GREATEST}) {
-            CHECKS.throwsArgument("balanced(" + n + ")", Checks::lived, x -> x.balanced(n));
+            CHECKS.throwsArgument("balanced(" + n + ")", Meadows::lived, x -> x.balanced(n));
         }
     }
 
     private static void promise23Blocks() {
-        FencedRows x = Checks.fullOfFences();
+        FencedRows x = Meadows.fullOfFences();
         x.lie(11, 1);
         x.tell();
         for (int k = 0; k <= 11; k++) {
@@ -512,11 +496,11 @@ public final class WouldBeTest {
     }
 
     private static void promise23RowsOfTheBlock() {
-        FencedRows x = Checks.front(2, 2);
+        FencedRows x = Meadows.front(2, 2);
         x.lie(0, -1);
         x.tell();
         CHECKS.is("3 of 2 and 2, though others weigh 1", x.canBe(0), 0);
-        FencedRows later = Checks.front(2, 5, 5, 90);
+        FencedRows later = Meadows.front(2, 5, 5, 90);
         later.tell();
         later.weigh(0, 1);
         CHECKS.is("by their weights now", later.canBe(0), 0);
@@ -526,7 +510,7 @@ public final class WouldBeTest {
     }
 
     private static void promise23NoneOrAll() {
-        FencedRows none = Checks.front(3, 3);
+        FencedRows none = Meadows.front(3, 3);
         none.away(0, true);
         none.away(1, true);
         none.tell();
@@ -537,7 +521,7 @@ public final class WouldBeTest {
         none.lie(0, -2);
         none.tell();
         CHECKS.is("-2", none.canBe(0), 0);
-        FencedRows all = Checks.front(3, 3);
+        FencedRows all = Meadows.front(3, 3);
         all.tell();
         CHECKS.is("6, by all", all.canBe(0), 1);
         all.lie(0, 1);
@@ -547,7 +531,7 @@ public final class WouldBeTest {
         CHECKS.answers("1 more", WouldBeTest::allHeavy, x -> x.lie(0, 1) + x.tell() * 0 + x.canBe(0), 0);
         CHECKS.answers("1 less", WouldBeTest::allHeavy, x -> x.lie(0, -1) + x.tell() * 0 + x.canBe(0), 0);
         for (int weight = 1; weight <= 3; weight++) {
-            FencedRows x = allAway();
+            FencedRows x = Meadows.allAway();
             for (int r = 0; r < 48; r++) {
                 x.weigh(r, weight);
             }
@@ -560,7 +544,7 @@ public final class WouldBeTest {
     }
 
     private static int canBe(int lie, boolean... away) {
-        FencedRows x = Checks.front(2, 5, 5, 90);
+        FencedRows x = Meadows.front(2, 5, 5, 90);
         for (int r = 0; r < away.length; r++) {
             x.away(r, away[r]);
         }
@@ -582,7 +566,7 @@ public final class WouldBeTest {
         CHECKS.is("14", canBe(2, false, false, false, true), 0);
         CHECKS.is("92", canBe(2, true, true, true, false), 1);
         CHECKS.is("91", canBe(1, true, true, true, false), 0);
-        FencedRows x = Checks.front(64, 64, 1, 1);
+        FencedRows x = Meadows.front(64, 64, 1, 1);
         x.away(2, true);
         x.away(3, true);
         x.tell();
@@ -593,7 +577,7 @@ public final class WouldBeTest {
         x.tell();
         CHECKS.is("64 of 64, 99, 1 and 1", x.canBe(0), 1);
         for (int w = 1; w <= 99; w++) {
-            FencedRows y = Checks.front(63, w, 99);
+            FencedRows y = Meadows.front(63, w, 99);
             y.away(2, true);
             y.tell();
             CHECKS.is("63 and " + w, y.canBe(0), 1);
@@ -608,21 +592,21 @@ public final class WouldBeTest {
 
     private static void promise23NoBlock() {
         for (int k : NO_BLOCKS) {
-            CHECKS.throwsIndex("block " + k, Checks::lived, x -> x.canBe(k));
-            CHECKS.throwsIndex("block " + k + ", and no sums", () -> Checks.front(1), x -> x.canBe(k));
+            CHECKS.throwsIndex("block " + k, Meadows::lived, x -> x.canBe(k));
+            CHECKS.throwsIndex("block " + k + ", and no sums", () -> Meadows.front(1), x -> x.canBe(k));
         }
         CHECKS.throwsIndex("block 1 of one", FencedRows::new, x -> x.canBe(1));
-        CHECKS.throwsIndex("block 12 of twelve", Checks::fullOfFences, x -> x.canBe(12));
+        CHECKS.throwsIndex("block 12 of twelve", Meadows::fullOfFences, x -> x.canBe(12));
     }
 
     private static void promise23NoSums() {
-        CHECKS.throwsState("none yet", () -> Checks.front(1, 1), x -> x.canBe(1));
+        CHECKS.throwsState("none yet", () -> Meadows.front(1, 1), x -> x.canBe(1));
         CHECKS.throwsState("none yet, untrusted", () -> {
-            FencedRows x = Checks.front(1, 1);
+            FencedRows x = Meadows.front(1, 1);
             x.trust(0);
             return x;
         }, x -> x.canBe(0));
-        FencedRows x = uneven();
+        FencedRows x = Meadows.uneven();
         CHECKS.is("told", x.canBe(1), 1);
         x.fence(4, false);
         CHECKS.same("none any more", Checks.thrown(x, y -> y.canBe(0)), IllegalStateException.class.getName());
@@ -630,7 +614,7 @@ public final class WouldBeTest {
 
     /** Three blocks, of the rows 0 to 3, 4 to 9, and 10 to 47, whose sums were told when all were there. */
     private static FencedRows threeTold() {
-        FencedRows x = Checks.front(1, 1, 1, 1);
+        FencedRows x = Meadows.front(1, 1, 1, 1);
         x.fence(10, true);
         x.tell();
         return x;
@@ -650,7 +634,7 @@ public final class WouldBeTest {
         CHECKS.is("who is away does not count", x.farthest(), 1);
         x.away(20, false);
         CHECKS.is("the last, by 29", x.farthest(), 2);
-        FencedRows lies = Checks.front(1, 1, 1, 1);
+        FencedRows lies = Meadows.front(1, 1, 1, 1);
         lies.lie(0, -1);
         lies.lie(1, 2);
         lies.tell();
@@ -691,6 +675,6 @@ public final class WouldBeTest {
         x.away(20, true);
         x.fence(10, false);
         CHECKS.is("none any more", x.farthest(), NONE);
-        CHECKS.answers("untrusted", Checks::lived, FencedRows::farthest, 2);
+        CHECKS.answers("untrusted", Meadows::lived, FencedRows::farthest, 2);
     }
 }
